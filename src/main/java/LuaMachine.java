@@ -742,7 +742,10 @@ public final class LuaMachine {
         boolean reached;
         /** Strings of the chunk and of the machine itself never go. */
         boolean stays;
-        /** Closure: its prototype. Wrapper: its coroutine's slot. Coroutine: its place in the heap's row. Variable: likewise that of its register, or -1 when it is closed. */
+        /**
+         * Closure: its prototype. Wrapper: its coroutine's slot. Coroutine: its place in the heap's row.
+         * Variable: the place of the coroutine whose register it is, or -1 when it is closed.
+         */
         int link;
         /** Variable: the next open one below. String: the next one of its bucket. */
         int next;
@@ -834,13 +837,12 @@ public final class LuaMachine {
             return tally[EXISTING] >= most || type == COROUTINE && tally[COROUTINES] >= MOST_COROUTINES;
         }
 
-        /** A closed variable with the value nil. */
-        int makeVariable() {
+        int makeClosedVariable(int kind, long value) {
             int slot = make(VARIABLE, 0, 0);
             if (slot >= 0) {
                 things[slot].link = -1;
-                things[slot].cellKind = NIL;
-                things[slot].cellValue = 0;
+                things[slot].cellKind = kind;
+                things[slot].cellValue = value;
             }
             return slot;
         }
@@ -881,6 +883,9 @@ public final class LuaMachine {
 
         /** The string of these bytes, made if there is none; or an ERROR, negated. */
         int intern(byte[] source, int from, int size) {
+            if (size > MOST_BYTES_IN_ALL) {
+                return -ERROR_MADE;
+            }
             int hash = size;
             for (int i = 0; i < size; i++) {
                 hash = hash * 31 + source[from + i];
@@ -914,10 +919,6 @@ public final class LuaMachine {
                 }
             }
             return true;
-        }
-
-        int internWork() {
-            return workSize > MOST_BYTES_IN_ALL ? -ERROR_MADE : intern(work, 0, workSize);
         }
 
         /** What goes beyond any string that can be made is only counted. */
@@ -994,7 +995,7 @@ public final class LuaMachine {
             if (slot >= 0 && things[slot].place == register) {
                 return slot;
             }
-            int made = makeVariable();
+            int made = make(VARIABLE, 0, 0);
             if (made < 0) {
                 return made;
             }
@@ -1040,7 +1041,12 @@ public final class LuaMachine {
             reachRow(machine.args.kinds, machine.args.values, 0, machine.args.size);
             for (int n = 0; waitingCount > 0 && n < MOST_LIMIT; n++) {
                 waitingCount--;
-                reachFrom(waiting[waitingCount]);
+                Thing thing = things[waiting[waitingCount]];
+                if (thing.type == COROUTINE) {
+                    reachFromCoroutine(coroutines[thing.link]);
+                } else {
+                    reachFrom(thing);
+                }
             }
             sweep();
         }
@@ -1065,8 +1071,7 @@ public final class LuaMachine {
             }
         }
 
-        private void reachFrom(int slot) {
-            Thing thing = things[slot];
+        private void reachFrom(Thing thing) {
             switch (thing.type) {
                 case TABLE:
                     reach(TABLE, thing.metatable);
@@ -1084,16 +1089,13 @@ public final class LuaMachine {
                 case WRAPPER:
                     reach(COROUTINE, thing.link);
                     break;
-                case VARIABLE:
+                default:
                     if (thing.link < 0) {
                         reach(thing.cellKind, thing.cellValue);
                     } else {
                         Coroutine owner = coroutines[thing.link];
                         reach(owner.kinds[thing.place], owner.values[thing.place]);
                     }
-                    break;
-                default:
-                    reachFromCoroutine(coroutines[thing.link]);
                     break;
             }
         }
@@ -1482,12 +1484,8 @@ public final class LuaMachine {
                 || !internNames(TYPE_AND_STATUS_NAMES, TYPE_NAMES)) {
                 return false;
             }
-            int variable = heap.makeVariable();
-            if (variable < 0) {
-                return false;
-            }
-            heap.setVariable(variable, TABLE, globals);
-            return internConstants() && fillGlobals() && beginMain(variable);
+            int variable = heap.makeClosedVariable(TABLE, globals);
+            return variable >= 0 && internConstants() && fillGlobals() && beginMain(variable);
         }
 
         /** The names of a text become the heap's, from the first place on. */
@@ -1498,7 +1496,7 @@ public final class LuaMachine {
                 if (names.charAt(i) != ' ') {
                     heap.putByte(names.charAt(i));
                 } else {
-                    int slot = heap.internWork();
+                    int slot = heap.intern(heap.work, 0, heap.workSize);
                     if (slot < 0) {
                         return false;
                     }
@@ -1825,18 +1823,27 @@ public final class LuaMachine {
             machine.stepCount++;
             machine.current.top().pc++;
             decode();
-            if (operation <= 12) {
-                move();
-            } else if (operation <= 24) {
-                reckon();
-            } else if (operation <= 29) {
-                reckonOne();
-            } else if (operation <= 35) {
-                branch();
-            } else if (operation <= 38 || operation == 41) {
-                callOrReturn();
-            } else {
-                loopOrList();
+            switch (operation) {
+                case 8: write(heap.variableKind(upvalue(a)), heap.variableValue(upvalue(a))); break;
+                case 10: write(kindOf(a), valueOf(a)); break;
+                case 11: newTable(); break;
+                case 43: setList(); break;
+                case 44: makeClosure(); break;
+                default:
+                    if (operation <= 12) {
+                        move();
+                    } else if (operation <= 24) {
+                        reckon();
+                    } else if (operation <= 29) {
+                        reckonOne();
+                    } else if (operation <= 35) {
+                        branch();
+                    } else if (operation <= 38 || operation == 41) {
+                        callOrReturn();
+                    } else {
+                        loopOrTake();
+                    }
+                    break;
             }
         }
 
@@ -1908,17 +1915,8 @@ public final class LuaMachine {
                 case 7:
                     read(kindOf(b), valueOf(b), kindOf(c), valueOf(c));
                     break;
-                case 8:
-                    write(heap.variableKind(upvalue(a)), heap.variableValue(upvalue(a)));
-                    break;
                 case 9:
                     heap.setVariable(upvalue(b), kindOf(a), valueOf(a));
-                    break;
-                case 10:
-                    write(kindOf(a), valueOf(a));
-                    break;
-                case 11:
-                    newTable();
                     break;
                 default:
                     int kind = kindOf(b);
@@ -1999,7 +1997,10 @@ public final class LuaMachine {
 
         private void reckon() {
             if (kindOf(b) != INTEGER || kindOf(c) != INTEGER) {
-                callEither(operation <= 16 ? operation - 10 : operation - 12, kindOf(b), valueOf(b), kindOf(c), valueOf(c));
+                int event = operation <= 16 ? operation - 10 : operation - 12;
+                if (!callsEither(event, kindOf(b), valueOf(b), kindOf(c), valueOf(c))) {
+                    machine.fail(ERROR_TYPE);
+                }
                 return;
             }
             long x = valueOf(b);
@@ -2033,19 +2034,16 @@ public final class LuaMachine {
             return left >= 0 ? x << left : x >>> -left;
         }
 
-        /** Where the first of two values that has an event has its handler, or -1. */
-        private int findEither(int event, int kind, long value, int otherKind, long otherValue) {
+        /** The first of two values that has an event: its handler is called with both. False if none has it. */
+        private boolean callsEither(int event, int kind, long value, int otherKind, long otherValue) {
             int at = tables.findEvent(kind, value, event);
-            return at >= 0 ? at : tables.findEvent(otherKind, otherValue, event);
-        }
-
-        private void callEither(int event, int kind, long value, int otherKind, long otherValue) {
-            int at = findEither(event, kind, value, otherKind, otherValue);
             if (at < 0) {
-                machine.fail(ERROR_TYPE);
-            } else {
+                at = tables.findEvent(otherKind, otherValue, event);
+            }
+            if (at >= 0) {
                 machine.callEntry(at, kind, value, otherKind, otherValue);
             }
+            return at >= 0;
         }
 
         private void reckonOne() {
@@ -2065,8 +2063,8 @@ public final class LuaMachine {
                 default:
                     if (kindOf(b) == INTEGER) {
                         set(a, INTEGER, operation == 25 ? -valueOf(b) : ~valueOf(b));
-                    } else {
-                        callEither(operation - 12, kindOf(b), valueOf(b), kindOf(b), valueOf(b));
+                    } else if (!callsEither(operation - 12, kindOf(b), valueOf(b), kindOf(b), valueOf(b))) {
+                        machine.fail(ERROR_TYPE);
                     }
                     break;
             }
@@ -2094,7 +2092,9 @@ public final class LuaMachine {
             for (int at = frame.joinAt; at >= b; at--) {
                 frame.joinAt = at - 1;
                 if (!isText(kindOf(at)) || !isText(frame.joinedKind)) {
-                    callEither(CONCAT_EVENT, kindOf(at), valueOf(at), frame.joinedKind, frame.joinedValue);
+                    if (!callsEither(CONCAT_EVENT, kindOf(at), valueOf(at), frame.joinedKind, frame.joinedValue)) {
+                        machine.fail(ERROR_TYPE);
+                    }
                     return;
                 }
                 int slot = joined(kindOf(at), valueOf(at));
@@ -2119,7 +2119,7 @@ public final class LuaMachine {
             heap.workSize = 0;
             putText(kind, value);
             putText(frame.joinedKind, frame.joinedValue);
-            return heap.internWork();
+            return heap.intern(heap.work, 0, heap.workSize);
         }
 
         private void putText(int kind, long value) {
@@ -2167,12 +2167,9 @@ public final class LuaMachine {
             long value = valueOf(b);
             long otherValue = valueOf(c);
             boolean same = kind == otherKind && value == otherValue;
-            int handler = same || kind != TABLE || otherKind != TABLE ? -1
-                : findEither(EQ_EVENT, kind, value, otherKind, otherValue);
-            if (handler < 0) {
+            if (same || kind != TABLE || otherKind != TABLE
+                || !callsEither(EQ_EVENT, kind, value, otherKind, otherValue)) {
                 decide(same);
-            } else {
-                machine.callEntry(handler, kind, value, otherKind, otherValue);
             }
         }
 
@@ -2186,8 +2183,8 @@ public final class LuaMachine {
             } else if (kind == STRING && otherKind == STRING) {
                 int order = compared(heap.things[(int) value].bytes, heap.things[(int) otherValue].bytes);
                 decide(operation == 32 ? order < 0 : order <= 0);
-            } else {
-                callEither(LT_EVENT + operation - 32, kind, value, otherKind, otherValue);
+            } else if (!callsEither(LT_EVENT + operation - 32, kind, value, otherKind, otherValue)) {
+                machine.fail(ERROR_TYPE);
             }
         }
 
@@ -2282,7 +2279,7 @@ public final class LuaMachine {
             }
         }
 
-        private void loopOrList() {
+        private void loopOrTake() {
             switch (operation) {
                 case 39:
                     loop();
@@ -2298,12 +2295,6 @@ public final class LuaMachine {
                         set(a, kindOf(a + 1), valueOf(a + 1));
                         jump();
                     }
-                    break;
-                case 43:
-                    setList();
-                    break;
-                case 44:
-                    makeClosure();
                     break;
                 default:
                     takeFurther();
@@ -2412,96 +2403,74 @@ public final class LuaMachine {
 
         /** Those that go on elsewhere set the machine's turn themselves. */
         void perform() {
-            int which = (int) (-1 - machine.calleeValue);
             results.clear();
             machine.turn = GIVE;
-            if (which <= 4) {
-                performBasic(which);
-            } else if (which <= 12) {
-                performOnTables(which);
-            } else if (which <= 16) {
-                performOnStrings(which);
-            } else {
-                performOnCoroutines(which);
+            switch ((int) (-1 - machine.calleeValue)) {
+                case 0: print(); break;
+                case 1: makeText(); break;
+                case 2: results.add(STRING, heap.names[TYPE_NAMES + typeOf(args.kindAt(0))]); break;
+                case 3: machine.raise(args.kindAt(0), args.valueAt(0)); break;
+                case 4: callProtected(); break;
+                case 5: setMetatable(); break;
+                case 6: getMetatable(); break;
+                case 7: readRaw(); break;
+                case 8: writeRaw(); break;
+                case 9: measureRaw(); break;
+                case 10: compareRaw(); break;
+                case 11: next(); break;
+                case 12: select(); break;
+                case 13: cut(); break;
+                case 14: tellByte(); break;
+                case 15: makeOfBytes(); break;
+                case 16: measure(); break;
+                case 17: create(); break;
+                case 18: resume(); break;
+                case 19: giveWay(); break;
+                case 20: tellStatus(); break;
+                case 21: tellRunning(); break;
+                case 22: wrap(); break;
+                default: cleanUp(); break;
             }
             if (machine.turn == GIVE) {
                 args.clear();
             }
         }
 
-        private void performBasic(int which) {
-            switch (which) {
-                case 0: print(); break;
-                case 1: text(); break;
-                case 2: results.add(STRING, heap.names[TYPE_NAMES + typeOf(args.kindAt(0))]); break;
-                case 3: machine.raise(args.kindAt(0), args.valueAt(0)); break;
-                default: callProtected(); break;
-            }
-        }
-
-        private void performOnTables(int which) {
-            if (which == 10) {
-                boolean same = args.kindAt(0) == args.kindAt(1) && args.valueAt(0) == args.valueAt(1);
-                addTruth(same);
-            } else if (which == 12) {
-                select();
-            } else if (which == 6) {
-                getMetatable();
-            } else if (which == 9 && args.kindAt(0) == STRING) {
-                results.add(INTEGER, heap.things[(int) args.valueAt(0)].bytes.length);
-            } else if (args.kindAt(0) != TABLE) {
+        private boolean hasTable() {
+            if (args.kindAt(0) != TABLE) {
                 machine.fail(ERROR_TABLE);
-            } else {
-                performOnTable(which, (int) args.valueAt(0));
             }
+            return args.kindAt(0) == TABLE;
         }
 
-        private void performOnTable(int which, int table) {
-            switch (which) {
-                case 5: setMetatable(table); break;
-                case 7: addEntry(tables.find(table, args.kindAt(1), args.valueAt(1))); break;
-                case 8: writeRaw(table); break;
-                case 9: results.add(INTEGER, tables.border(table)); break;
-                default: next(table); break;
+        private boolean hasCoroutine() {
+            if (args.kindAt(0) != COROUTINE) {
+                machine.fail(ERROR_TABLE);
             }
+            return args.kindAt(0) == COROUTINE;
         }
 
-        private void performOnStrings(int which) {
-            if (which == 15) {
-                join();
-            } else if (args.kindAt(0) != STRING || !isNumberOrNil(1, which <= 14) || !isNumberOrNil(2, which == 13)) {
+        private boolean hasFunction() {
+            if (args.kindAt(0) != FUNCTION) {
+                machine.fail(ERROR_CALL);
+            }
+            return args.kindAt(0) == FUNCTION;
+        }
+
+        /** A string, and so many arguments behind it that are integers or nil. */
+        private boolean hasString(int numbers) {
+            boolean right = args.kindAt(0) == STRING;
+            for (int i = 1; i <= numbers; i++) {
+                right = right && (args.kindAt(i) == NIL || args.kindAt(i) == INTEGER);
+            }
+            if (!right) {
                 machine.fail(ERROR_TYPE);
-            } else if (which == 13) {
-                cut(heap.things[(int) args.valueAt(0)].bytes);
-            } else if (which == 14) {
-                byteAt(heap.things[(int) args.valueAt(0)].bytes);
-            } else {
-                results.add(INTEGER, heap.things[(int) args.valueAt(0)].bytes.length);
             }
+            return right;
         }
 
-        private boolean isNumberOrNil(int i, boolean asked) {
-            return !asked || args.kindAt(i) == NIL || args.kindAt(i) == INTEGER;
-        }
-
-        private void performOnCoroutines(int which) {
-            switch (which) {
-                case 17: create(); break;
-                case 18: resume(); break;
-                case 19: giveWay(); break;
-                case 20: tellStatus(); break;
-                case 21:
-                    results.add(COROUTINE, machine.current.slot);
-                    addTruth(machine.current.resumer < 0);
-                    break;
-                case 22: wrap(); break;
-                default:
-                    // it makes nothing, so that its arguments are not in hand
-                    args.clear();
-                    heap.clean();
-                    results.add(INTEGER, heap.tally[EXISTING]);
-                    break;
-            }
+        private byte[] bytesOfFirst() {
+            return heap.things[(int) args.valueAt(0)].bytes;
         }
 
         private void addTruth(boolean truth) {
@@ -2570,7 +2539,7 @@ public final class LuaMachine {
             heap.putDecimal(heap.numberOf(value));
         }
 
-        private void text() {
+        private void makeText() {
             int kind = args.kindAt(0);
             long value = args.valueAt(0);
             int handler = tables.findEvent(kind, value, TOSTRING_EVENT);
@@ -2585,7 +2554,7 @@ public final class LuaMachine {
                 results.add(STRING, value);
             } else {
                 describe(kind, value);
-                addMade(STRING, heap.internWork());
+                addMade(STRING, heap.intern(heap.work, 0, heap.workSize));
             }
         }
 
@@ -2600,7 +2569,11 @@ public final class LuaMachine {
             machine.turn = ENTER;
         }
 
-        private void setMetatable(int table) {
+        private void setMetatable() {
+            if (!hasTable()) {
+                return;
+            }
+            int table = (int) args.valueAt(0);
             if (args.kindAt(1) != TABLE && args.kindAt(1) != NIL) {
                 machine.fail(ERROR_TABLE);
             } else if (tables.findEvent(TABLE, table, METATABLE_EVENT) >= 0) {
@@ -2623,7 +2596,17 @@ public final class LuaMachine {
             }
         }
 
-        private void writeRaw(int table) {
+        private void readRaw() {
+            if (hasTable()) {
+                addEntry(tables.find((int) args.valueAt(0), args.kindAt(1), args.valueAt(1)));
+            }
+        }
+
+        private void writeRaw() {
+            if (!hasTable()) {
+                return;
+            }
+            int table = (int) args.valueAt(0);
             int error = tables.write(table, args.kindAt(1), args.valueAt(1), args.kindAt(2), args.valueAt(2));
             if (error != 0) {
                 machine.fail(error);
@@ -2632,7 +2615,23 @@ public final class LuaMachine {
             }
         }
 
-        private void next(int slot) {
+        private void measureRaw() {
+            if (args.kindAt(0) == STRING) {
+                results.add(INTEGER, bytesOfFirst().length);
+            } else if (hasTable()) {
+                results.add(INTEGER, tables.border((int) args.valueAt(0)));
+            }
+        }
+
+        private void compareRaw() {
+            addTruth(args.kindAt(0) == args.kindAt(1) && args.valueAt(0) == args.valueAt(1));
+        }
+
+        private void next() {
+            if (!hasTable()) {
+                return;
+            }
+            int slot = (int) args.valueAt(0);
             Thing table = heap.things[slot];
             int from = table.start;
             if (args.kindAt(1) != NIL) {
@@ -2669,11 +2668,15 @@ public final class LuaMachine {
             if (args.kindAt(0) != STRING) {
                 return false;
             }
-            byte[] bytes = heap.things[(int) args.valueAt(0)].bytes;
+            byte[] bytes = bytesOfFirst();
             return bytes.length == 1 && bytes[0] == '#';
         }
 
-        private void cut(byte[] bytes) {
+        private void cut() {
+            if (!hasString(2)) {
+                return;
+            }
+            byte[] bytes = bytesOfFirst();
             long first = args.kindAt(1) == NIL ? 1 : fromFront(args.valueAt(1), bytes.length);
             long last = args.kindAt(2) == NIL ? bytes.length : fromFront(args.valueAt(2), bytes.length);
             int from = (int) Math.min(Math.max(first, 1), bytes.length + 1L);
@@ -2689,7 +2692,11 @@ public final class LuaMachine {
             return place < -size ? 0 : size + place + 1;
         }
 
-        private void byteAt(byte[] bytes) {
+        private void tellByte() {
+            if (!hasString(1)) {
+                return;
+            }
+            byte[] bytes = bytesOfFirst();
             long place = args.kindAt(1) == NIL ? 1 : fromFront(args.valueAt(1), bytes.length);
             if (place < 1 || place > bytes.length) {
                 results.add(NIL, 0);
@@ -2698,7 +2705,13 @@ public final class LuaMachine {
             }
         }
 
-        private void join() {
+        private void measure() {
+            if (hasString(0)) {
+                results.add(INTEGER, bytesOfFirst().length);
+            }
+        }
+
+        private void makeOfBytes() {
             heap.workSize = 0;
             for (int i = 0; i < args.size; i++) {
                 if (args.kinds[i] != INTEGER) {
@@ -2711,20 +2724,17 @@ public final class LuaMachine {
                 }
                 heap.putByte((int) args.values[i]);
             }
-            addMade(STRING, heap.internWork());
+            addMade(STRING, heap.intern(heap.work, 0, heap.workSize));
         }
 
         private void create() {
-            if (args.kindAt(0) != FUNCTION) {
-                machine.fail(ERROR_CALL);
-            } else {
+            if (hasFunction()) {
                 addMade(COROUTINE, heap.makeCoroutine(args.valueAt(0)));
             }
         }
 
         private void wrap() {
-            if (args.kindAt(0) != FUNCTION) {
-                machine.fail(ERROR_CALL);
+            if (!hasFunction()) {
                 return;
             }
             int coroutine = heap.makeCoroutine(args.valueAt(0));
@@ -2742,8 +2752,7 @@ public final class LuaMachine {
         }
 
         private void resume() {
-            if (args.kindAt(0) != COROUTINE) {
-                machine.fail(ERROR_TABLE);
+            if (!hasCoroutine()) {
                 return;
             }
             Coroutine c = machine.coroutineOf((int) args.valueAt(0));
@@ -2768,12 +2777,22 @@ public final class LuaMachine {
         }
 
         private void tellStatus() {
-            if (args.kindAt(0) != COROUTINE) {
-                machine.fail(ERROR_TABLE);
-            } else {
+            if (hasCoroutine()) {
                 Coroutine c = machine.coroutineOf((int) args.valueAt(0));
                 results.add(STRING, heap.names[STATUS_NAMES + c.status]);
             }
+        }
+
+        private void tellRunning() {
+            results.add(COROUTINE, machine.current.slot);
+            addTruth(machine.current.resumer < 0);
+        }
+
+        /** It makes nothing, so that its arguments are not in hand. */
+        private void cleanUp() {
+            args.clear();
+            heap.clean();
+            results.add(INTEGER, heap.tally[EXISTING]);
         }
     }
 }
