@@ -608,14 +608,10 @@ public final class LuaMachine {
         }
 
         private static boolean isThere(char name, int x, Prototype p) {
-            switch (name) {
-                case 'R': return x < p.registers;
-                case 'U': return x < p.upvalues;
-                case 'K': return x < FIRST_CONSTANT ? x < p.registers : x - FIRST_CONSTANT < p.constants;
-                case 'T': return x <= 1;
-                case '-': return true;
-                default: return false;
+            if (name == 'K') {
+                return x < FIRST_CONSTANT ? x < p.registers : x - FIRST_CONSTANT < p.constants;
             }
+            return name == 'R' && x < p.registers || name == 'U' && x < p.upvalues || name == 'T' && x <= 1 || name == '-';
         }
 
         /** The last register of the rows that an operation names; what it has none of gives one that is there. */
@@ -1369,7 +1365,7 @@ public final class LuaMachine {
         int base;
         int extra;
         int pc;
-        /** What a joining that waits for a __concat has in hand, and which register is next. */
+        /** What a joining has in hand, and which register is next. */
         int joinedKind;
         long joinedValue;
         int joinAt;
@@ -1740,6 +1736,7 @@ public final class LuaMachine {
         /** The error goes to the nearest pcall of the running coroutine, or ends it. */
         void unwind() {
             args.clear();
+            open.clear();
             if (fatal) {
                 endAll();
                 return;
@@ -2095,6 +2092,7 @@ public final class LuaMachine {
                     if (!callsEither(CONCAT_EVENT, kindOf(at), valueOf(at), frame.joinedKind, frame.joinedValue)) {
                         machine.fail(ERROR_TYPE);
                     }
+                    forgetJoined();
                     return;
                 }
                 int slot = joined(kindOf(at), valueOf(at));
@@ -2106,9 +2104,14 @@ public final class LuaMachine {
                 frame.joinedValue = slot;
             }
             set(a, frame.joinedKind, frame.joinedValue);
+            forgetJoined();
+            machine.turn = NEXT_STEP;
+        }
+
+        /** What has been handed on must not be kept from the collector. */
+        private void forgetJoined() {
             frame.joinedKind = NIL;
             frame.joinedValue = 0;
-            machine.turn = NEXT_STEP;
         }
 
         private static boolean isText(int kind) {

@@ -1,0 +1,30 @@
+/** Promise 3: end. */
+public final class Promise03EndTest {
+    public static void main(String[] args) {
+        LuaMachine x = new LuaMachine();
+        Due.is("end(0) of an empty tape", x.end(0), 0);
+        Due.isThrown("end(1) of an empty tape", () -> x.end(1), IllegalArgumentException.class);
+        x.feed(1, 2, 3, 4, 5);
+        Due.is("end at the length", x.end(20), 20);
+        Due.isThrown("end behind the length", () -> x.end(21), IllegalArgumentException.class);
+        Due.isThrown("end below 0", () -> x.end(-1), IllegalArgumentException.class);
+        Due.isThrown("end far below 0", () -> x.end(Integer.MIN_VALUE), IllegalArgumentException.class);
+        Due.is("end", x.end(7), 7);
+        Due.is("count(0)", x.count(0), 7);
+        Due.isThrown("end behind what has stayed", () -> x.end(8), IllegalArgumentException.class);
+        Due.is("end(0)", x.end(0), 0);
+        Due.is("count(0) at last", x.count(0), 0);
+        keepsTheFirstBytes();
+        Due.end();
+    }
+
+    private static void keepsTheFirstBytes() {
+        Play play = new Play();
+        byte[] chunk = Assembler.chunk("main 2\n LOADK 0 #5\n RETURN 0 2");
+        play.put(chunk);
+        play.x.feed(-1, -1, -1, -1, -1);
+        play.x.end(chunk.length);
+        Due.is("load of the first bytes", play.x.load(), 1);
+        Due.is("what they do", play.finish(), "5");
+    }
+}
