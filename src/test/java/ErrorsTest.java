@@ -1,0 +1,76 @@
+/** Errors: what they are given to, and what goes. */
+public final class ErrorsTest {
+    public static void main(String[] args) {
+        goToTheNearestPcall();
+        closeVariables();
+        endTheProgram();
+        areAnyValues();
+        areNotCaughtWhenAllIsMade();
+        comeFromWhatMakesTooMuch();
+        Due.end();
+    }
+
+    private static void due(String program, String want) {
+        Due.is(program.replace('\n', ';'), Play.answer(program), want);
+    }
+
+    private static void goToTheNearestPcall() {
+        due("main 4\n GLOBAL 0 'pcall'\n GLOBAL 1 'error'\n LOADK 2 #5\n CALL 0 3 0\n RETURN 0 0", "false 5");
+        due("main 4\n GLOBAL 0 'pcall'\n GLOBAL 1 'type'\n LOADK 2 #5\n CALL 0 3 0\n RETURN 0 0", "true 'number'");
+        due("main 4\n GLOBAL 0 'pcall'\n GLOBAL 1 'pcall'\n GLOBAL 2 'error'\n LOADK 3 #5\n CALL 0 4 0\n RETURN 0 0", "true false 5");
+        due("main 4\n GLOBAL 0 'pcall'\n LOADK 1 #1\n CALL 0 2 0\n RETURN 0 0", "false 1");
+        due("main 4\n GLOBAL 0 'pcall'\n CLOSURE 1 f\n CALL 0 2 0\n RETURN 0 0\n function f 0 0 3\n CLOSURE 0 g\n CALL 0 1 1\n RETURN 0 1\n function g 0 0 2\n LOADK 0 #1\n MOD 0 0 #0\n RETURN 0 1\n end\n end", "false 5");
+        due("main 4\n GLOBAL 0 'pcall'\n CLOSURE 1 f\n CALL 0 2 3\n GLOBAL 2 'pcall'\n CALL 2 1 3\n RETURN 0 5\n function f 0 0 3\n ADD 0 0 0\n RETURN 0 1\n end", "false 3 false 1");
+    }
+
+    private static void closeVariables() {
+        due("main 4\n GLOBAL 0 'pcall'\n CLOSURE 1 f\n CALL 0 2 1\n GLOBAL 0 'get'\n CALL 0 1 2\n RETURN 0 2\n"
+            + "function f 0 0 3 u0\n LOADK 0 #1\n CLOSURE 1 get\n SETGLOBAL 'get' 1\n LOADK 0 #2\n ADD 1 1 1\n RETURN 0 1\n function get 0 0 2 r0\n GETUPVAL 0 0\n RETURN 0 2\n end\n end", "2");
+    }
+
+    private static void endTheProgram() {
+        Play play = Play.of("main 4\n CLOSURE 0 f\n CALL 0 1 1\n RETURN 0 1\n function f 0 0 3 u0\n GLOBAL 0 'error'\n NEWTABLE 1\n CALL 0 2 1\n RETURN 0 1\n end");
+        Due.is("an error that is a table", play.finish(), "error table:61");
+        Due.is("frames", play.x.count(9), 0);
+        Due.is("what is left: main, its error and not its closures", play.x.collect(), 59);
+        Due.is("the error stays", play.results(), "table:61");
+    }
+
+    private static void areAnyValues() {
+        due("main 4\n GLOBAL 0 'pcall'\n GLOBAL 1 'error'\n LOADBOOL 2 0 0\n CALL 0 3 0\n RETURN 0 0", "false false");
+        due("main 4\n GLOBAL 0 'pcall'\n GLOBAL 1 'error'\n CALL 0 2 0\n RETURN 0 0", "false nil");
+        due("main 4\n GLOBAL 0 'pcall'\n GLOBAL 1 'error'\n LOADK 2 #11\n CALL 0 3 0\n RETURN 0 0", "false 11");
+        due("main 4\n GLOBAL 0 'pcall'\n GLOBAL 1 'error'\n LOADK 2 #1\n LOADK 3 #2\n CALL 0 4 0\n RETURN 0 0", "false 1");
+    }
+
+    /** A string that doubles without end, inside pcall inside a coroutine inside pcall. */
+    private static void areNotCaughtWhenAllIsMade() {
+        String doubling = "function grow 0 0 5\n LOADK 0 'ab'\nbody:\n MOVE 1 0\n MOVE 2 0\n CONCAT 0 1 2\n JMP 0 >body\n end";
+        Play play = Play.of("main 4\n GLOBAL 0 'pcall'\n GLOBAL 1 'wrap'\n CLOSURE 2 f\n CALL 1 2 2\n SETGLOBAL 'w' 1\n CALL 0 2 0\n RETURN 0 0\n"
+            + "function f 0 0 3 u0\n GLOBAL 0 'pcall'\n CLOSURE 1 grow\n CALL 0 2 0\n RETURN 0 0\n" + doubling + "\n end");
+        Due.is("bytes", play.finish(), "error 11");
+        Due.is("bytes made", play.x.count(8), 335 + 1 + 262_142);
+        Due.is("frames", play.x.count(9), 0);
+        Due.is("what is left", play.x.collect(), 58 + 1 + 1 + 1 + 1);
+        Play tables = Play.of("main 4\n GLOBAL 0 'pcall'\n CLOSURE 1 f\n CALL 0 2 0\n RETURN 0 0\n function f 0 0 3\nbody:\n NEWTABLE 0\n JMP 0 >body\n end");
+        Due.is("objects", tables.finish(), "error 11");
+        Due.is("objects made", tables.x.count(4), 60_000);
+        Play rooms = Play.of("main 4\n GLOBAL 0 'pcall'\n CLOSURE 1 f\n CALL 0 2 0\n RETURN 0 0\n function f 0 0 3\nbody:\n NEWTABLE 0\n SETTABLE 0 #1 #1\n SETTABLE 0 #2 #1\n SETTABLE 0 #3 #1\n SETTABLE 0 #4 #1\n SETTABLE 0 #5 #1\n JMP 0 >body\n end");
+        Due.is("room", rooms.finish(), "error 11");
+        Due.is("room made", rooms.x.count(7), 61 + (300_000 - 61) / 12 * 12 + 4);
+        Play closures = Play.of("main 4\n GLOBAL 0 'pcall'\n CLOSURE 1 f\n CALL 0 2 0\n RETURN 0 0\n function f 0 0 3\nbody:\n CLOSURE 1 g\n JMP 0 >body\n function g 0 0 2 r0 r0 r0 r0 r0 r0 r0\n RETURN 0 1\n end\n end");
+        Due.is("upvalues", closures.finish(), "error 11");
+        Due.is("upvalues made", closures.x.count(7), 61 + (300_000 - 61) / 7 * 7);
+    }
+
+    private static void comeFromWhatMakesTooMuch() {
+        Play play = Play.of("main 4\n GLOBAL 0 'pcall'\n CLOSURE 1 f\n CALL 0 2 0\n RETURN 0 0\n function f 0 0 3\n NEWTABLE 0\nbody:\n NEWTABLE 1\n SETTABLE 0 1 true\n JMP 0 >body\n end");
+        play.x.limit(200);
+        Due.is("objects that exist", play.finish(), "false 10");
+        Due.is("existing", play.x.count(3), 200);
+        Due.is("collections", play.x.count(5), 1);
+        Play rooms = Play.of("main 8\n NEWTABLE 0\n LOADK 1 #1\n LOADK 2 #40000\n LOADK 3 #1\n FORPREP 1 >next\nbody:\n SETTABLE 0 4 4\nnext:\n FORLOOP 1 >body\n RETURN 0 1");
+        Due.is("rooms that exist", rooms.finish(), "error 10");
+        Due.is("rooms", rooms.x.count(6), 32 + 16_384);
+    }
+}
