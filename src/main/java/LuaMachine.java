@@ -31,7 +31,9 @@ public final class LuaMachine {
     private static final int MOST_HOPS = 100;
     private static final int MOST_OUTPUT = 20_000;
     private static final int BUCKETS = 4_096;
+    /** In an instruction: the first B or C that is a constant, and the Bx that jumps nowhere. */
     private static final int FIRST_CONSTANT = 256;
+    private static final int JUMP_ZERO = 131_071;
 
     private static final int NIL = 0;
     private static final int FALSE = 1;
@@ -114,7 +116,6 @@ public final class LuaMachine {
     private static final int NORMAL = 2;
     private static final int DEAD = 3;
 
-    private final byte[] tape = new byte[TAPE_ROOM];
     private int tapeLength;
     private boolean loaded;
     private final Chunk chunk;
@@ -124,7 +125,7 @@ public final class LuaMachine {
     private final BuiltIns builtIns;
 
     public LuaMachine() {
-        chunk = new Chunk(tape);
+        chunk = new Chunk();
         heap = new Heap();
         Tables tables = new Tables(heap);
         machine = new Machine(chunk, heap, tables);
@@ -148,7 +149,7 @@ public final class LuaMachine {
 
     private void putOnTape(int number) {
         for (int shift = 24; shift >= 0; shift -= 8) {
-            tape[tapeLength] = (byte) (number >> shift);
+            chunk.tape[tapeLength] = (byte) (number >> shift);
             tapeLength++;
         }
     }
@@ -319,7 +320,6 @@ public final class LuaMachine {
         private static final int SET_LIST = 43;
         private static final int CLOSURE = 44;
         private static final int MORE_ARGUMENTS = 45;
-        private static final int JUMP_ZERO = 131_071;
         /** What A, B and C of each operation name: Register, Upvalue, K register or constant, Truth 0 or 1, x no operation. */
         private static final String A_NAMES = "RRxRRRRRURRRRRRRRxxRRRRRRRRRRR-TTTRRRRRRRRRRRR";
         private static final String B_NAMES = "R-x--UURKUK-RKKKKxxKKKKKKRRRRR-KKK-R----------";
@@ -333,7 +333,7 @@ public final class LuaMachine {
         final long[] constantValues = new long[MOST_PARTS];
         /** A register of the one around, or -1 - an upvalue of it. */
         final int[] upvalues = new int[MOST_PROTOTYPES * MOST_UPVALUES];
-        final byte[] tape;
+        final byte[] tape = new byte[TAPE_ROOM];
         private final int[] open = new int[DEEPEST_PROTOTYPE];
         private final int[] left = new int[DEEPEST_PROTOTYPE];
         int prototypeCount;
@@ -344,10 +344,6 @@ public final class LuaMachine {
         private int at;
         int faultFound;
         int faultPlace = -1;
-
-        Chunk(byte[] tape) {
-            this.tape = tape;
-        }
 
         boolean readAll(int tapeLength) {
             begin(tapeLength);
@@ -1382,7 +1378,7 @@ public final class LuaMachine {
         int slot;
         int status;
         boolean begun;
-        /** What it begins with, -1 when it has begun without an object. */
+        /** What it begins with; no object any more when it has begun. */
         long function;
         int newestOpen;
         /** Place of the one that resumed it, or -1. */
@@ -1883,7 +1879,7 @@ public final class LuaMachine {
         }
 
         private void jump() {
-            frame.pc += bx - 131_071;
+            frame.pc += bx - JUMP_ZERO;
         }
 
         private void move() {
