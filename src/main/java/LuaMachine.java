@@ -304,7 +304,7 @@ public final class LuaMachine {
         int around;
     }
 
-    /** Reads a chunk from the tape and looks it over. */
+    /** Holds the tape, reads a chunk from it and looks it over. */
     private static final class Chunk {
         private static final int TOO_SHORT = 1;
         private static final int NOT_SO = 2;
@@ -758,9 +758,10 @@ public final class LuaMachine {
     /** All objects, strings among them, and the collector. */
     private static final class Heap {
         final Thing[] things = new Thing[MOST_LIMIT];
+        /** How many slots have been in use since load; those of them that are free again. */
+        private int slots;
         private final int[] free = new int[MOST_LIMIT];
         private int freeCount;
-        private int highest;
         final int[] tally = new int[TALLIES];
         final int[] names = new int[ALL_NAMES];
         final Coroutine[] coroutines = new Coroutine[MOST_COROUTINES];
@@ -776,14 +777,8 @@ public final class LuaMachine {
         Machine machine;
 
         void restart() {
-            for (int slot = 0; slot < highest; slot++) {
-                things[slot].type = FREE;
-            }
-            for (int i = 0; i < MOST_LIMIT; i++) {
-                free[i] = MOST_LIMIT - 1 - i;
-            }
-            freeCount = MOST_LIMIT;
-            highest = 0;
+            slots = 0;
+            freeCount = 0;
             Arrays.fill(tally, 0, ALL_MADE, 0);
             Arrays.fill(buckets, -1);
             for (int i = 0; i < MOST_COROUTINES; i++) {
@@ -805,12 +800,7 @@ public final class LuaMachine {
             if (isFull(type)) {
                 return -ERROR_FULL;
             }
-            freeCount--;
-            int slot = free[freeCount];
-            highest = Math.max(highest, slot + 1);
-            if (things[slot] == null) {
-                things[slot] = new Thing();
-            }
+            int slot = takeSlot();
             Thing thing = things[slot];
             thing.type = type;
             thing.number = tally[MADE];
@@ -822,6 +812,19 @@ public final class LuaMachine {
             tally[ALL_ROOM] += upvalueCount;
             tally[BYTES_MADE] += byteCount;
             tally[ALL_BYTES] += byteCount;
+            return slot;
+        }
+
+        private int takeSlot() {
+            if (freeCount > 0) {
+                freeCount--;
+                return free[freeCount];
+            }
+            int slot = slots;
+            slots++;
+            if (things[slot] == null) {
+                things[slot] = new Thing();
+            }
             return slot;
         }
 
@@ -1017,7 +1020,7 @@ public final class LuaMachine {
         /** COLLECTION. */
         void clean() {
             tally[COLLECTIONS]++;
-            for (int slot = 0; slot < highest; slot++) {
+            for (int slot = 0; slot < slots; slot++) {
                 things[slot].reached = things[slot].stays;
             }
             waitingCount = 0;
@@ -1109,7 +1112,7 @@ public final class LuaMachine {
         }
 
         private void sweep() {
-            for (int slot = 0; slot < highest; slot++) {
+            for (int slot = 0; slot < slots; slot++) {
                 Thing thing = things[slot];
                 if (thing.type != FREE && !thing.reached) {
                     if (thing.type == STRING) {
@@ -1789,7 +1792,7 @@ public final class LuaMachine {
         }
     }
 
-    /** Does the instructions. */
+    /** Does the instructions; operations bear the document's numbers. */
     private static final class Steps {
         private final Machine machine;
         private final Heap heap;
@@ -2382,7 +2385,7 @@ public final class LuaMachine {
         }
     }
 
-    /** The built in functions; a call's arguments are the machine's args. */
+    /** The built in functions, numbered as BUILT_IN_NAMES has them; a call's arguments are the machine's args. */
     private static final class BuiltIns {
         final byte[] printed = new byte[MOST_OUTPUT];
         int outputSize;

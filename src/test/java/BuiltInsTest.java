@@ -13,10 +13,6 @@ public final class BuiltInsTest {
         Due.end();
     }
 
-    private static void due(String program, String want) {
-        Due.is(program.replace('\n', ';'), Play.answer(program), want);
-    }
-
     /** A call of a built in function with constants: all its results. */
     private static void called(String call, String want) {
         String[] words = call.split(" ");
@@ -24,7 +20,7 @@ public final class BuiltInsTest {
         for (int i = 1; i < words.length; i++) {
             text.append(words[i].equals("{}") ? "NEWTABLE " + i : "LOADK " + i + " " + words[i]).append('\n');
         }
-        due(text + "CALL 0 " + words.length + " 0\n RETURN 0 0", want);
+        Play.due(text + "CALL 0 " + words.length + " 0\n RETURN 0 0", want);
     }
 
     private static void makesTexts() {
@@ -35,14 +31,14 @@ public final class BuiltInsTest {
         called("tostring #10", "'10'");
         called("tostring 'a'", "'a'");
         called("tostring {}", "'table: 60'");
-        due("main 4\n GLOBAL 0 'tostring'\n CLOSURE 1 f\n CALL 0 2 2\n GLOBAL 1 'tostring'\n GLOBAL 2 'collect'\n CALL 1 2 2\n GLOBAL 2 'tostring'\n GLOBAL 3 'running'\n CALL 3 1 2\n CALL 2 2 2\n RETURN 0 4\n"
+        Play.due("main 4\n GLOBAL 0 'tostring'\n CLOSURE 1 f\n CALL 0 2 2\n GLOBAL 1 'tostring'\n GLOBAL 2 'collect'\n CALL 1 2 2\n GLOBAL 2 'tostring'\n GLOBAL 3 'running'\n CALL 3 1 2\n CALL 2 2 2\n RETURN 0 4\n"
             + "function f 0 0 2\n RETURN 0 1\n end", "'function: 60' 'builtin: 23' 'thread: 59'");
         String table = "main 6\n NEWTABLE 0\n NEWTABLE 1\n CLOSURE 2 f\n SETTABLE 1 '__tostring' 2\n GLOBAL 2 'setmetatable'\n MOVE 3 0\n MOVE 4 1\n CALL 2 3 1\n GLOBAL 2 'tostring'\n MOVE 3 0\n CALL 2 2 0\n RETURN 2 0\n";
-        due(table + "function f 0 1 3 u0\n GLOBAL 0 'type'\n VARARG 1 0\n CALL 0 0 2\n LOADK 1 #9\n RETURN 0 3\n end", "'table'");
-        due(table + "function f 1 0 3\n LOADK 0 #9\n RETURN 0 2\n end", "error 3");
-        due(table + "function f 1 0 3\n RETURN 0 1\n end", "error 3");
-        due(table.replace("CLOSURE 2 f", "GLOBAL 2 'tostring'") + "function f 1 0 3\n RETURN 0 1\n end", "error 4");
-        due(table.replace("CLOSURE 2 f", "LOADK 2 #1") + "function f 1 0 3\n RETURN 0 1\n end", "error 1");
+        Play.due(table + "function f 0 1 3 u0\n GLOBAL 0 'type'\n VARARG 1 0\n CALL 0 0 2\n LOADK 1 #9\n RETURN 0 3\n end", "'table'");
+        Play.due(table + "function f 1 0 3\n LOADK 0 #9\n RETURN 0 2\n end", "error 3");
+        Play.due(table + "function f 1 0 3\n RETURN 0 1\n end", "error 3");
+        Play.due(table.replace("CLOSURE 2 f", "GLOBAL 2 'tostring'") + "function f 1 0 3\n RETURN 0 1\n end", "error 4");
+        Play.due(table.replace("CLOSURE 2 f", "LOADK 2 #1") + "function f 1 0 3\n RETURN 0 1\n end", "error 1");
     }
 
     private static void namesTypes() {
@@ -51,7 +47,7 @@ public final class BuiltInsTest {
         for (int i = 0; i < values.length; i++) {
             called("type " + values[i], "'" + names[i] + "'");
         }
-        due("main 4\n GLOBAL 0 'type'\n MOVE 1 0\n CALL 0 2 2\n GLOBAL 1 'type'\n GLOBAL 2 'running'\n CALL 2 1 2\n CALL 1 2 2\n RETURN 0 3", "'function' 'thread'");
+        Play.due("main 4\n GLOBAL 0 'type'\n MOVE 1 0\n CALL 0 2 2\n GLOBAL 1 'type'\n GLOBAL 2 'running'\n CALL 2 1 2\n CALL 1 2 2\n RETURN 0 3", "'function' 'thread'");
     }
 
     private static void setsMetatables() {
@@ -62,11 +58,11 @@ public final class BuiltInsTest {
         called("getmetatable {}", "nil");
         called("getmetatable 'a'", "nil");
         String table = "main 6\n NEWTABLE 0\n NEWTABLE 1\n%s\n GLOBAL 2 'setmetatable'\n MOVE 3 0\n MOVE 4 1\n CALL 2 3 1\n";
-        due(String.format(table, "") + "GLOBAL 2 'getmetatable'\n MOVE 3 0\n CALL 2 2 2\n RETURN 2 2", "table:61");
-        due(String.format(table, "SETTABLE 1 '__metatable' false") + "GLOBAL 2 'getmetatable'\n MOVE 3 0\n CALL 2 2 2\n RETURN 2 2", "false");
-        due(String.format(table, "SETTABLE 1 '__metatable' false") + "GLOBAL 2 'setmetatable'\n MOVE 3 0\n LOADNIL 4 0\n CALL 2 3 2\n RETURN 2 2", "error 8");
-        due(String.format(table, "SETTABLE 1 '__metatable' false") + "GLOBAL 2 'setmetatable'\n MOVE 3 0\n LOADK 4 #1\n CALL 2 3 2\n RETURN 2 2", "error 2");
-        due(String.format(table, "") + "GLOBAL 2 'setmetatable'\n MOVE 3 0\n LOADNIL 4 0\n CALL 2 3 2\n GLOBAL 3 'getmetatable'\n MOVE 4 0\n CALL 3 2 2\n RETURN 2 3", "table:60 nil");
+        Play.due(String.format(table, "") + "GLOBAL 2 'getmetatable'\n MOVE 3 0\n CALL 2 2 2\n RETURN 2 2", "table:61");
+        Play.due(String.format(table, "SETTABLE 1 '__metatable' false") + "GLOBAL 2 'getmetatable'\n MOVE 3 0\n CALL 2 2 2\n RETURN 2 2", "false");
+        Play.due(String.format(table, "SETTABLE 1 '__metatable' false") + "GLOBAL 2 'setmetatable'\n MOVE 3 0\n LOADNIL 4 0\n CALL 2 3 2\n RETURN 2 2", "error 8");
+        Play.due(String.format(table, "SETTABLE 1 '__metatable' false") + "GLOBAL 2 'setmetatable'\n MOVE 3 0\n LOADK 4 #1\n CALL 2 3 2\n RETURN 2 2", "error 2");
+        Play.due(String.format(table, "") + "GLOBAL 2 'setmetatable'\n MOVE 3 0\n LOADNIL 4 0\n CALL 2 3 2\n GLOBAL 3 'getmetatable'\n MOVE 4 0\n CALL 3 2 2\n RETURN 2 3", "table:60 nil");
     }
 
     private static void worksWithoutMetamethods() {
@@ -84,7 +80,7 @@ public final class BuiltInsTest {
         called("rawequal 'ab' 'ab'", "true");
         called("next #1", "error 2");
         String table = "main 6\n NEWTABLE 0\n NEWTABLE 1\n GLOBAL 2 'error'\n SETTABLE 1 '__index' 2\n SETTABLE 1 '__newindex' 2\n SETTABLE 1 '__len' 2\n SETTABLE 1 '__eq' 2\n GLOBAL 2 'setmetatable'\n MOVE 3 0\n MOVE 4 1\n CALL 2 3 1\n";
-        due(table + "GLOBAL 2 'rawset'\n MOVE 3 0\n LOADK 4 #1\n LOADK 5 #7\n CALL 2 4 1\n GLOBAL 2 'rawget'\n MOVE 3 0\n LOADK 4 #1\n CALL 2 3 2\n GLOBAL 3 'rawlen'\n MOVE 4 0\n CALL 3 2 2\n"
+        Play.due(table + "GLOBAL 2 'rawset'\n MOVE 3 0\n LOADK 4 #1\n LOADK 5 #7\n CALL 2 4 1\n GLOBAL 2 'rawget'\n MOVE 3 0\n LOADK 4 #1\n CALL 2 3 2\n GLOBAL 3 'rawlen'\n MOVE 4 0\n CALL 3 2 2\n"
             + "GLOBAL 4 'rawequal'\n MOVE 5 0\n CALL 4 2 2\n RETURN 2 4", "7 1 false");
     }
 

@@ -14,10 +14,6 @@ public final class CollectionTest {
         Due.end();
     }
 
-    private static void due(String program, String want) {
-        Due.is(program.replace('\n', ';'), Play.answer(program), want);
-    }
-
     /** What a program's "collect" gives at its end, above the 60 that every program has. */
     private static void kept(String program, int want) {
         Play play = Play.of(program);
@@ -111,7 +107,7 @@ public final class CollectionTest {
     }
 
     private static void isCalledByPrograms() {
-        due("main 4\n NEWTABLE 0\n NEWTABLE 0\n GLOBAL 1 'collect'\n CALL 1 1 0\n RETURN 1 0", "61");
+        Play.due("main 4\n NEWTABLE 0\n NEWTABLE 0\n GLOBAL 1 'collect'\n CALL 1 1 0\n RETURN 1 0", "61");
         Play play = Play.of("main 4\n GLOBAL 0 'collect'\n CALL 0 1 1\n GLOBAL 0 'collect'\n CALL 0 1 1\n RETURN 0 1");
         play.finish();
         Due.is("collections", play.x.count(5), 2);

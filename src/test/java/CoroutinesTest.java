@@ -14,49 +14,45 @@ public final class CoroutinesTest {
         Due.end();
     }
 
-    private static void due(String program, String want) {
-        Due.is(program.replace('\n', ';'), Play.answer(program), want);
-    }
-
     private static void passesValuesBothWays() {
         String f = "\n function f 2 0 6 u0\n GLOBAL 2 'yield'\n ADD 3 0 1\n CALL 2 2 3\n ADD 4 2 3\n RETURN 2 4\n end";
         String begin = "main 12\n GLOBAL 0 'create'\n CLOSURE 1 f\n CALL 0 2 2\n GLOBAL 1 'resume'\n MOVE 2 0\n LOADK 3 #5\n LOADK 4 #6\n CALL 1 4 3\n";
-        due(begin + "RETURN 1 3" + f, "true 11");
-        due(begin + "GLOBAL 3 'resume'\n MOVE 4 0\n LOADK 5 #1\n LOADK 6 #2\n CALL 3 4 0\n RETURN 3 0" + f, "true 1 2 3");
-        due(begin + "GLOBAL 3 'resume'\n MOVE 4 0\n LOADK 5 #1\n LOADK 6 #2\n CALL 3 4 1\n GLOBAL 3 'resume'\n MOVE 4 0\n CALL 3 2 0\n RETURN 3 0" + f, "false 9");
-        due("main 3\n GLOBAL 0 'yield'\n CALL 0 1 1\n RETURN 0 1", "error 9");
-        due("main 3\n GLOBAL 0 'resume'\n LOADK 1 #1\n CALL 0 2 1\n RETURN 0 1", "error 2");
-        due("main 3\n GLOBAL 0 'create'\n NEWTABLE 1\n CALL 0 2 1\n RETURN 0 1", "error 1");
+        Play.due(begin + "RETURN 1 3" + f, "true 11");
+        Play.due(begin + "GLOBAL 3 'resume'\n MOVE 4 0\n LOADK 5 #1\n LOADK 6 #2\n CALL 3 4 0\n RETURN 3 0" + f, "true 1 2 3");
+        Play.due(begin + "GLOBAL 3 'resume'\n MOVE 4 0\n LOADK 5 #1\n LOADK 6 #2\n CALL 3 4 1\n GLOBAL 3 'resume'\n MOVE 4 0\n CALL 3 2 0\n RETURN 3 0" + f, "false 9");
+        Play.due("main 3\n GLOBAL 0 'yield'\n CALL 0 1 1\n RETURN 0 1", "error 9");
+        Play.due("main 3\n GLOBAL 0 'resume'\n LOADK 1 #1\n CALL 0 2 1\n RETURN 0 1", "error 2");
+        Play.due("main 3\n GLOBAL 0 'create'\n NEWTABLE 1\n CALL 0 2 1\n RETURN 0 1", "error 1");
     }
 
     private static void tellsStates() {
-        due("main 8\n GLOBAL 0 'running'\n CALL 0 1 3\n GLOBAL 2 'status'\n MOVE 3 0\n CALL 2 2 2\n RETURN 0 4", "coroutine:59 true 'running'");
-        due("main 8\n GLOBAL 0 'create'\n CLOSURE 1 f\n CALL 0 2 2\n SETGLOBAL 'c' 0\n GLOBAL 1 'running'\n CALL 1 1 2\n SETGLOBAL 'm' 1\n GLOBAL 1 'status'\n MOVE 2 0\n CALL 1 2 2\n"
+        Play.due("main 8\n GLOBAL 0 'running'\n CALL 0 1 3\n GLOBAL 2 'status'\n MOVE 3 0\n CALL 2 2 2\n RETURN 0 4", "coroutine:59 true 'running'");
+        Play.due("main 8\n GLOBAL 0 'create'\n CLOSURE 1 f\n CALL 0 2 2\n SETGLOBAL 'c' 0\n GLOBAL 1 'running'\n CALL 1 1 2\n SETGLOBAL 'm' 1\n GLOBAL 1 'status'\n MOVE 2 0\n CALL 1 2 2\n"
             + "GLOBAL 2 'resume'\n MOVE 3 0\n CALL 2 2 5\n GLOBAL 6 'status'\n MOVE 7 0\n CALL 6 2 2\n RETURN 1 7\n"
             + "function f 0 0 6 u0\n GLOBAL 0 'status'\n GLOBAL 1 'c'\n CALL 0 2 2\n GLOBAL 1 'status'\n GLOBAL 2 'm'\n CALL 1 2 2\n GLOBAL 2 'running'\n CALL 2 1 3\n MOVE 2 3\n RETURN 0 4\n end",
             "'suspended' true 'running' 'normal' false 'dead'");
-        due("main 8\n GLOBAL 0 'create'\n CLOSURE 1 f\n CALL 0 2 2\n SETGLOBAL 'c' 0\n GLOBAL 2 'resume'\n MOVE 3 0\n CALL 2 2 0\n RETURN 2 0\n"
+        Play.due("main 8\n GLOBAL 0 'create'\n CLOSURE 1 f\n CALL 0 2 2\n SETGLOBAL 'c' 0\n GLOBAL 2 'resume'\n MOVE 3 0\n CALL 2 2 0\n RETURN 2 0\n"
             + "function f 0 0 4 u0\n GLOBAL 0 'resume'\n GLOBAL 1 'c'\n CALL 0 2 0\n RETURN 0 0\n end", "true false 9");
-        due("main 8\n GLOBAL 0 'resume'\n GLOBAL 1 'running'\n CALL 1 1 2\n CALL 0 2 0\n RETURN 0 0", "false 9");
+        Play.due("main 8\n GLOBAL 0 'resume'\n GLOBAL 1 'running'\n CALL 1 1 2\n CALL 0 2 0\n RETURN 0 0", "false 9");
     }
 
     private static void endsByErrors() {
-        due("main 8\n GLOBAL 0 'create'\n CLOSURE 1 f\n CALL 0 2 2\n GLOBAL 1 'resume'\n MOVE 2 0\n CALL 1 2 3\n GLOBAL 3 'status'\n MOVE 4 0\n CALL 3 2 2\n RETURN 1 4\n"
+        Play.due("main 8\n GLOBAL 0 'create'\n CLOSURE 1 f\n CALL 0 2 2\n GLOBAL 1 'resume'\n MOVE 2 0\n CALL 1 2 3\n GLOBAL 3 'status'\n MOVE 4 0\n CALL 3 2 2\n RETURN 1 4\n"
             + "function f 0 0 3\n ADD 0 0 0\n RETURN 0 1\n end", "false 3 'dead'");
-        due("main 8\n GLOBAL 0 'create'\n CLOSURE 1 f\n CALL 0 2 2\n GLOBAL 1 'resume'\n MOVE 2 0\n CALL 1 2 0\n RETURN 1 0\n"
+        Play.due("main 8\n GLOBAL 0 'create'\n CLOSURE 1 f\n CALL 0 2 2\n GLOBAL 1 'resume'\n MOVE 2 0\n CALL 1 2 0\n RETURN 1 0\n"
             + "function f 0 0 4 u0\n GLOBAL 0 'pcall'\n CLOSURE 1 g\n CALL 0 2 0\n RETURN 0 0\n function g 0 0 2\n CALL 0 1 1\n RETURN 0 1\n end\n end", "true false 1");
     }
 
     private static void wraps() {
         String f = "\n function f 1 0 6 u0\n GLOBAL 1 'yield'\n MOVE 2 0\n CALL 1 2 2\n LOADK 2 #8\n RETURN 1 3\n end\n function bad 0 0 3\n ADD 0 0 0\n RETURN 0 1\n end";
         String begin = "main 8\n GLOBAL 0 'wrap'\n CLOSURE 1 f\n CALL 0 2 2\n MOVE 1 0\n LOADK 2 #4\n CALL 1 2 2\n MOVE 2 0\n LOADK 3 #5\n CALL 2 2 3\n";
-        due(begin + "RETURN 1 4" + f, "4 5 8");
-        due(begin + "GLOBAL 4 'pcall'\n MOVE 5 0\n CALL 4 2 0\n RETURN 4 0" + f, "false 9");
-        due(begin + "MOVE 4 0\n CALL 4 1 1\n RETURN 4 1" + f, "error 9");
-        due("main 8\n GLOBAL 0 'wrap'\n CLOSURE 1 bad\n CALL 0 2 2\n MOVE 1 0\n CALL 1 1 1\n RETURN 0 1" + f, "error 3");
-        due("main 8\n GLOBAL 0 'pcall'\n GLOBAL 1 'wrap'\n CLOSURE 2 bad\n CALL 1 2 2\n CALL 0 2 0\n RETURN 0 0" + f, "false 3");
-        due("main 8\n GLOBAL 0 'wrap'\n CLOSURE 1 f\n CALL 0 2 2\n RETURN 0 2" + f, "function:62");
-        due("main 8\n GLOBAL 0 'wrap'\n LOADK 1 'f'\n CALL 0 2 2\n RETURN 0 2" + f, "error 1");
+        Play.due(begin + "RETURN 1 4" + f, "4 5 8");
+        Play.due(begin + "GLOBAL 4 'pcall'\n MOVE 5 0\n CALL 4 2 0\n RETURN 4 0" + f, "false 9");
+        Play.due(begin + "MOVE 4 0\n CALL 4 1 1\n RETURN 4 1" + f, "error 9");
+        Play.due("main 8\n GLOBAL 0 'wrap'\n CLOSURE 1 bad\n CALL 0 2 2\n MOVE 1 0\n CALL 1 1 1\n RETURN 0 1" + f, "error 3");
+        Play.due("main 8\n GLOBAL 0 'pcall'\n GLOBAL 1 'wrap'\n CLOSURE 2 bad\n CALL 1 2 2\n CALL 0 2 0\n RETURN 0 0" + f, "false 3");
+        Play.due("main 8\n GLOBAL 0 'wrap'\n CLOSURE 1 f\n CALL 0 2 2\n RETURN 0 2" + f, "function:62");
+        Play.due("main 8\n GLOBAL 0 'wrap'\n LOADK 1 'f'\n CALL 0 2 2\n RETURN 0 2" + f, "error 1");
     }
 
     /** In metamethods of each kind, in an iterator, in pcall, in tostring. */
@@ -64,11 +60,11 @@ public final class CoroutinesTest {
         String[] bodies = {"GETTABLE 1 0 'x'", "ADD 1 0 #1", "UNM 1 0", "LEN 1 0", "LOADK 1 'a'\n MOVE 2 0\n CONCAT 1 1 2", "MOVE 1 0\n CALL 1 1 2",
             "GLOBAL 1 'pcall'\n GLOBAL 2 'yield'\n LOADK 3 #1\n CALL 1 3 3\n MOVE 1 2", "MOVE 1 0\n TFORCALL 1 1\n MOVE 1 4"};
         for (String body : bodies) {
-            due(inCoroutine(body + "\n RETURN 1 2"), "42");
+            Play.due(inCoroutine(body + "\n RETURN 1 2"), "42");
         }
-        due(inCoroutine("NEWTABLE 1\n LT 1 0 1\n JMP 0 1\n RETURN 0 1\n EQ 0 0 1\n JMP 0 1\n LOADK 1 #42\n RETURN 1 2"), "42");
-        due(inCoroutine("SETTABLE 0 'q' #1\n LOADK 1 #42\n RETURN 1 2"), "42");
-        due(inCoroutine("GLOBAL 1 'tostring'\n MOVE 2 0\n CALL 1 2 2\n RETURN 1 2").replace("LOADK 4 #42", "LOADK 4 'forty'"), "'forty'");
+        Play.due(inCoroutine("NEWTABLE 1\n LT 1 0 1\n JMP 0 1\n RETURN 0 1\n EQ 0 0 1\n JMP 0 1\n LOADK 1 #42\n RETURN 1 2"), "42");
+        Play.due(inCoroutine("SETTABLE 0 'q' #1\n LOADK 1 #42\n RETURN 1 2"), "42");
+        Play.due(inCoroutine("GLOBAL 1 'tostring'\n MOVE 2 0\n CALL 1 2 2\n RETURN 1 2").replace("LOADK 4 #42", "LOADK 4 'forty'"), "'forty'");
     }
 
     /** R(0) has a metatable whose handlers all give way, and give what they are resumed with. */
@@ -83,20 +79,20 @@ public final class CoroutinesTest {
     }
 
     private static void givesWayInPlaceOfAFrame() {
-        due("main 8\n GLOBAL 0 'create'\n CLOSURE 1 f\n CALL 0 2 2\n GLOBAL 1 'resume'\n MOVE 2 0\n CALL 1 2 3\n GLOBAL 3 'resume'\n MOVE 4 0\n LOADK 5 #6\n CALL 3 3 3\n"
+        Play.due("main 8\n GLOBAL 0 'create'\n CLOSURE 1 f\n CALL 0 2 2\n GLOBAL 1 'resume'\n MOVE 2 0\n CALL 1 2 3\n GLOBAL 3 'resume'\n MOVE 4 0\n LOADK 5 #6\n CALL 3 3 3\n"
             + "GLOBAL 5 'status'\n MOVE 6 0\n CALL 5 2 2\n RETURN 1 6\n function f 0 0 3 u0\n GLOBAL 0 'yield'\n LOADK 1 #5\n TAILCALL 0 2\n end", "true 5 true 6 'dead'");
     }
 
     private static void beginsWithBuiltInFunctions() {
         String resume = "CALL 0 2 2\n GLOBAL 1 'resume'\n MOVE 2 0\n LOADK 3 'a'\n LOADK 4 'b'\n CALL 1 4 0\n RETURN 1 0";
-        due("main 8\n GLOBAL 0 'create'\n GLOBAL 1 'select'\n " + resume, "false 7");
-        due("main 8\n GLOBAL 0 'create'\n GLOBAL 1 'type'\n " + resume, "true 'string'");
-        due("main 8\n GLOBAL 0 'create'\n GLOBAL 1 'error'\n " + resume, "false 'a'");
-        due("main 8\n GLOBAL 0 'create'\n GLOBAL 1 'pcall'\n " + resume, "true false 1");
-        due("main 8\n GLOBAL 0 'create'\n GLOBAL 1 'yield'\n " + resume, "true 'a' 'b'");
-        due("main 8\n GLOBAL 0 'create'\n GLOBAL 1 'yield'\n CALL 0 2 2\n GLOBAL 1 'resume'\n MOVE 2 0\n CALL 1 2 1\n GLOBAL 1 'resume'\n MOVE 2 0\n LOADK 3 #3\n CALL 1 3 3\n GLOBAL 3 'status'\n MOVE 4 0\n CALL 3 2 2\n RETURN 1 4",
+        Play.due("main 8\n GLOBAL 0 'create'\n GLOBAL 1 'select'\n " + resume, "false 7");
+        Play.due("main 8\n GLOBAL 0 'create'\n GLOBAL 1 'type'\n " + resume, "true 'string'");
+        Play.due("main 8\n GLOBAL 0 'create'\n GLOBAL 1 'error'\n " + resume, "false 'a'");
+        Play.due("main 8\n GLOBAL 0 'create'\n GLOBAL 1 'pcall'\n " + resume, "true false 1");
+        Play.due("main 8\n GLOBAL 0 'create'\n GLOBAL 1 'yield'\n " + resume, "true 'a' 'b'");
+        Play.due("main 8\n GLOBAL 0 'create'\n GLOBAL 1 'yield'\n CALL 0 2 2\n GLOBAL 1 'resume'\n MOVE 2 0\n CALL 1 2 1\n GLOBAL 1 'resume'\n MOVE 2 0\n LOADK 3 #3\n CALL 1 3 3\n GLOBAL 3 'status'\n MOVE 4 0\n CALL 3 2 2\n RETURN 1 4",
             "true 3 'dead'");
-        due("main 8\n GLOBAL 0 'create'\n GLOBAL 1 'wrap'\n GLOBAL 2 'type'\n CALL 1 2 2\n " + resume, "true 'string'");
+        Play.due("main 8\n GLOBAL 0 'create'\n GLOBAL 1 'wrap'\n GLOBAL 2 'type'\n CALL 1 2 2\n " + resume, "true 'string'");
     }
 
     /** A variable of a coroutine's frame, seen from outside while it is suspended, and when the coroutine has gone. */
@@ -104,8 +100,8 @@ public final class CoroutinesTest {
         String f = "function f 0 0 4 u0\n LOADK 0 #1\n CLOSURE 1 get\n SETGLOBAL 'get' 1\n CLOSURE 1 add\n SETGLOBAL 'add' 1\n GLOBAL 1 'yield'\n CALL 1 1 1\n RETURN 0 2\n"
             + "function get 0 0 2 r0\n GETUPVAL 0 0\n RETURN 0 2\n end\n function add 0 0 2 r0\n GETUPVAL 0 0\n ADD 0 0 #1\n SETUPVAL 0 0\n RETURN 0 1\n end\n end";
         String begin = "main 8\n GLOBAL 0 'wrap'\n CLOSURE 1 f\n CALL 0 2 2\n MOVE 1 0\n CALL 1 1 1\n GLOBAL 1 'add'\n CALL 1 1 1\n GLOBAL 1 'get'\n CALL 1 1 2\n";
-        due(begin + "MOVE 2 0\n CALL 2 1 2\n RETURN 1 3\n" + f, "2 2");
-        due(begin + "LOADNIL 0 0\n GLOBAL 2 'collect'\n CALL 2 1 1\n NEWTABLE 2\n GLOBAL 3 'create'\n GLOBAL 4 'print'\n CALL 3 2 1\n GLOBAL 2 'add'\n CALL 2 1 1\n GLOBAL 2 'get'\n CALL 2 1 2\n RETURN 1 3\n" + f, "2 3");
+        Play.due(begin + "MOVE 2 0\n CALL 2 1 2\n RETURN 1 3\n" + f, "2 2");
+        Play.due(begin + "LOADNIL 0 0\n GLOBAL 2 'collect'\n CALL 2 1 1\n NEWTABLE 2\n GLOBAL 3 'create'\n GLOBAL 4 'print'\n CALL 3 2 1\n GLOBAL 2 'add'\n CALL 2 1 1\n GLOBAL 2 'get'\n CALL 2 1 2\n RETURN 1 3\n" + f, "2 3");
     }
 
     private static void limitsHowMany() {
@@ -120,6 +116,6 @@ public final class CoroutinesTest {
 
     private static void limitsFramesOfEachAlone() {
         String f = "\n function f 1 0 4 u0\n GLOBAL 1 'n'\n ADD 1 1 #1\n SETGLOBAL 'n' 1\n GLOBAL 1 'f'\n CALL 1 1 1\n RETURN 0 1\n end\n function g 0 0 4 u0\n GLOBAL 0 'resume'\n GLOBAL 1 'create'\n GLOBAL 2 'f'\n CALL 1 2 2\n CALL 0 2 0\n RETURN 0 0\n end";
-        due("main 4\n SETGLOBAL 'n' #0\n CLOSURE 0 f\n SETGLOBAL 'f' 0\n CLOSURE 0 g\n CALL 0 1 3\n GLOBAL 2 'n'\n RETURN 0 4" + f, "false 4 200");
+        Play.due("main 4\n SETGLOBAL 'n' #0\n CLOSURE 0 f\n SETGLOBAL 'f' 0\n CLOSURE 0 g\n CALL 0 1 3\n GLOBAL 2 'n'\n RETURN 0 4" + f, "false 4 200");
     }
 }

@@ -10,21 +10,17 @@ public final class ErrorsTest {
         Due.end();
     }
 
-    private static void due(String program, String want) {
-        Due.is(program.replace('\n', ';'), Play.answer(program), want);
-    }
-
     private static void goToTheNearestPcall() {
-        due("main 4\n GLOBAL 0 'pcall'\n GLOBAL 1 'error'\n LOADK 2 #5\n CALL 0 3 0\n RETURN 0 0", "false 5");
-        due("main 4\n GLOBAL 0 'pcall'\n GLOBAL 1 'type'\n LOADK 2 #5\n CALL 0 3 0\n RETURN 0 0", "true 'number'");
-        due("main 4\n GLOBAL 0 'pcall'\n GLOBAL 1 'pcall'\n GLOBAL 2 'error'\n LOADK 3 #5\n CALL 0 4 0\n RETURN 0 0", "true false 5");
-        due("main 4\n GLOBAL 0 'pcall'\n LOADK 1 #1\n CALL 0 2 0\n RETURN 0 0", "false 1");
-        due("main 4\n GLOBAL 0 'pcall'\n CLOSURE 1 f\n CALL 0 2 0\n RETURN 0 0\n function f 0 0 3\n CLOSURE 0 g\n CALL 0 1 1\n RETURN 0 1\n function g 0 0 2\n LOADK 0 #1\n MOD 0 0 #0\n RETURN 0 1\n end\n end", "false 5");
-        due("main 4\n GLOBAL 0 'pcall'\n CLOSURE 1 f\n CALL 0 2 3\n GLOBAL 2 'pcall'\n CALL 2 1 3\n RETURN 0 5\n function f 0 0 3\n ADD 0 0 0\n RETURN 0 1\n end", "false 3 false 1");
+        Play.due("main 4\n GLOBAL 0 'pcall'\n GLOBAL 1 'error'\n LOADK 2 #5\n CALL 0 3 0\n RETURN 0 0", "false 5");
+        Play.due("main 4\n GLOBAL 0 'pcall'\n GLOBAL 1 'type'\n LOADK 2 #5\n CALL 0 3 0\n RETURN 0 0", "true 'number'");
+        Play.due("main 4\n GLOBAL 0 'pcall'\n GLOBAL 1 'pcall'\n GLOBAL 2 'error'\n LOADK 3 #5\n CALL 0 4 0\n RETURN 0 0", "true false 5");
+        Play.due("main 4\n GLOBAL 0 'pcall'\n LOADK 1 #1\n CALL 0 2 0\n RETURN 0 0", "false 1");
+        Play.due("main 4\n GLOBAL 0 'pcall'\n CLOSURE 1 f\n CALL 0 2 0\n RETURN 0 0\n function f 0 0 3\n CLOSURE 0 g\n CALL 0 1 1\n RETURN 0 1\n function g 0 0 2\n LOADK 0 #1\n MOD 0 0 #0\n RETURN 0 1\n end\n end", "false 5");
+        Play.due("main 4\n GLOBAL 0 'pcall'\n CLOSURE 1 f\n CALL 0 2 3\n GLOBAL 2 'pcall'\n CALL 2 1 3\n RETURN 0 5\n function f 0 0 3\n ADD 0 0 0\n RETURN 0 1\n end", "false 3 false 1");
     }
 
     private static void closeVariables() {
-        due("main 4\n GLOBAL 0 'pcall'\n CLOSURE 1 f\n CALL 0 2 1\n GLOBAL 0 'get'\n CALL 0 1 2\n RETURN 0 2\n"
+        Play.due("main 4\n GLOBAL 0 'pcall'\n CLOSURE 1 f\n CALL 0 2 1\n GLOBAL 0 'get'\n CALL 0 1 2\n RETURN 0 2\n"
             + "function f 0 0 3 u0\n LOADK 0 #1\n CLOSURE 1 get\n SETGLOBAL 'get' 1\n LOADK 0 #2\n ADD 1 1 1\n RETURN 0 1\n function get 0 0 2 r0\n GETUPVAL 0 0\n RETURN 0 2\n end\n end", "2");
     }
 
@@ -37,10 +33,10 @@ public final class ErrorsTest {
     }
 
     private static void areAnyValues() {
-        due("main 4\n GLOBAL 0 'pcall'\n GLOBAL 1 'error'\n LOADBOOL 2 0 0\n CALL 0 3 0\n RETURN 0 0", "false false");
-        due("main 4\n GLOBAL 0 'pcall'\n GLOBAL 1 'error'\n CALL 0 2 0\n RETURN 0 0", "false nil");
-        due("main 4\n GLOBAL 0 'pcall'\n GLOBAL 1 'error'\n LOADK 2 #11\n CALL 0 3 0\n RETURN 0 0", "false 11");
-        due("main 4\n GLOBAL 0 'pcall'\n GLOBAL 1 'error'\n LOADK 2 #1\n LOADK 3 #2\n CALL 0 4 0\n RETURN 0 0", "false 1");
+        Play.due("main 4\n GLOBAL 0 'pcall'\n GLOBAL 1 'error'\n LOADBOOL 2 0 0\n CALL 0 3 0\n RETURN 0 0", "false false");
+        Play.due("main 4\n GLOBAL 0 'pcall'\n GLOBAL 1 'error'\n CALL 0 2 0\n RETURN 0 0", "false nil");
+        Play.due("main 4\n GLOBAL 0 'pcall'\n GLOBAL 1 'error'\n LOADK 2 #11\n CALL 0 3 0\n RETURN 0 0", "false 11");
+        Play.due("main 4\n GLOBAL 0 'pcall'\n GLOBAL 1 'error'\n LOADK 2 #1\n LOADK 3 #2\n CALL 0 4 0\n RETURN 0 0", "false 1");
     }
 
     /** A string that doubles without end, inside pcall inside a coroutine inside pcall. */

@@ -14,22 +14,18 @@ public final class InstructionsTest {
         Due.end();
     }
 
-    private static void due(String program, String want) {
-        Due.is(program.replace('\n', ';'), Play.answer(program), want);
-    }
-
     private static void loadsAndMoves() {
-        due("main 6\n LOADK 0 #7\n MOVE 1 0\n LOADBOOL 2 0 0\n LOADBOOL 3 9 0\n LOADNIL 4 1\n RETURN 0 7", "7 7 false true nil nil");
-        due("main 4\n LOADK 0 #1\n LOADK 1 #2\n LOADK 2 #3\n LOADK 3 #4\n LOADNIL 1 1\n RETURN 0 5", "1 nil nil 4");
-        due("main 3\n LOADBOOL 0 1 1\n LOADK 0 #5\n RETURN 0 2", "true");
-        due("main 3\n LOADBOOL 0 1 0\n LOADK 0 #5\n RETURN 0 2", "5");
-        due("main 3\n NEWTABLE 0\n SETTABLE 0 'm' #6\n MOVE 2 0\n SELF 0 2 'm'\n EQ 1 1 2\n JMP 0 1\n LOADNIL 0 0\n RETURN 0 2", "6");
-        due("main 3\n SETGLOBAL 'x' #9\n GLOBAL 0 'x'\n GETUPVAL 1 0\n GETTABLE 1 1 'x'\n RETURN 0 3", "9 9");
-        due("main 3\n LOADK 0 #4\n SETUPVAL 0 0\n GETUPVAL 1 0\n RETURN 1 2", "4");
+        Play.due("main 6\n LOADK 0 #7\n MOVE 1 0\n LOADBOOL 2 0 0\n LOADBOOL 3 9 0\n LOADNIL 4 1\n RETURN 0 7", "7 7 false true nil nil");
+        Play.due("main 4\n LOADK 0 #1\n LOADK 1 #2\n LOADK 2 #3\n LOADK 3 #4\n LOADNIL 1 1\n RETURN 0 5", "1 nil nil 4");
+        Play.due("main 3\n LOADBOOL 0 1 1\n LOADK 0 #5\n RETURN 0 2", "true");
+        Play.due("main 3\n LOADBOOL 0 1 0\n LOADK 0 #5\n RETURN 0 2", "5");
+        Play.due("main 3\n NEWTABLE 0\n SETTABLE 0 'm' #6\n MOVE 2 0\n SELF 0 2 'm'\n EQ 1 1 2\n JMP 0 1\n LOADNIL 0 0\n RETURN 0 2", "6");
+        Play.due("main 3\n SETGLOBAL 'x' #9\n GLOBAL 0 'x'\n GETUPVAL 1 0\n GETTABLE 1 1 'x'\n RETURN 0 3", "9 9");
+        Play.due("main 3\n LOADK 0 #4\n SETUPVAL 0 0\n GETUPVAL 1 0\n RETURN 1 2", "4");
     }
 
     private static void reckoned(String operation, String x, String y, String want) {
-        due("main 3\n LOADK 0 " + x + "\n LOADK 1 " + y + "\n " + operation + " 2 0 1\n RETURN 2 2", want);
+        Play.due("main 3\n LOADK 0 " + x + "\n LOADK 1 " + y + "\n " + operation + " 2 0 1\n RETURN 2 2", want);
     }
 
     private static void reckons() {
@@ -48,8 +44,8 @@ public final class InstructionsTest {
         reckoned("BAND", "#12", "#10", "8");
         reckoned("BOR", "#12", "#10", "14");
         reckoned("BXOR", "#12", "#-1", "-13");
-        due("main 4\n LOADK 0 #5\n UNM 1 0\n BNOT 2 0\n NOT 3 0\n RETURN 1 4", "-5 -6 false");
-        due("main 3\n LOADK 0 #-9223372036854775808\n UNM 1 0\n LOADNIL 0 0\n NOT 2 0\n RETURN 1 3", "-9223372036854775808 true");
+        Play.due("main 4\n LOADK 0 #5\n UNM 1 0\n BNOT 2 0\n NOT 3 0\n RETURN 1 4", "-5 -6 false");
+        Play.due("main 3\n LOADK 0 #-9223372036854775808\n UNM 1 0\n LOADNIL 0 0\n NOT 2 0\n RETURN 1 3", "-9223372036854775808 true");
     }
 
     private static void shifts() {
@@ -75,19 +71,19 @@ public final class InstructionsTest {
             reckoned(operation, "'1'", "#1", "error 3");
             reckoned(operation, "#1", "nil", "error 3");
         }
-        due("main 2\n LOADK 0 '1'\n UNM 0 0\n RETURN 0 2", "error 3");
-        due("main 2\n BNOT 0 0\n RETURN 0 2", "error 3");
-        due("main 2\n LOADK 0 #1\n LEN 0 0\n RETURN 0 2", "error 2");
-        due("main 2\n LOADK 0 #1\n GETTABLE 0 0 #1\n RETURN 0 2", "error 2");
-        due("main 2\n LOADK 0 'a'\n SETTABLE 0 #1 #1\n RETURN 0 2", "error 2");
-        due("main 3\n SELF 0 0 'x'\n RETURN 0 2", "error 2");
+        Play.due("main 2\n LOADK 0 '1'\n UNM 0 0\n RETURN 0 2", "error 3");
+        Play.due("main 2\n BNOT 0 0\n RETURN 0 2", "error 3");
+        Play.due("main 2\n LOADK 0 #1\n LEN 0 0\n RETURN 0 2", "error 2");
+        Play.due("main 2\n LOADK 0 #1\n GETTABLE 0 0 #1\n RETURN 0 2", "error 2");
+        Play.due("main 2\n LOADK 0 'a'\n SETTABLE 0 #1 #1\n RETURN 0 2", "error 2");
+        Play.due("main 3\n SELF 0 0 'x'\n RETURN 0 2", "error 2");
     }
 
     private static void joins() {
-        due("main 4\n LOADK 0 'a'\n LOADK 1 #-12\n LOADK 2 'b'\n CONCAT 3 0 2\n RETURN 3 2", "'a-12b'");
-        due("main 4\n LOADK 0 #0\n LOADK 1 #-9223372036854775808\n CONCAT 3 0 1\n LEN 2 3\n RETURN 2 3", "21 '0-9223372036854775808'");
-        due("main 4\n LOADK 0 'a'\n LOADK 1 true\n CONCAT 3 0 1\n RETURN 3 2", "error 3");
-        due("main 4\n LOADK 0 ''\n LOADK 1 ''\n CONCAT 3 0 1\n LEN 2 3\n RETURN 2 3", "0 ''");
+        Play.due("main 4\n LOADK 0 'a'\n LOADK 1 #-12\n LOADK 2 'b'\n CONCAT 3 0 2\n RETURN 3 2", "'a-12b'");
+        Play.due("main 4\n LOADK 0 #0\n LOADK 1 #-9223372036854775808\n CONCAT 3 0 1\n LEN 2 3\n RETURN 2 3", "21 '0-9223372036854775808'");
+        Play.due("main 4\n LOADK 0 'a'\n LOADK 1 true\n CONCAT 3 0 1\n RETURN 3 2", "error 3");
+        Play.due("main 4\n LOADK 0 ''\n LOADK 1 ''\n CONCAT 3 0 1\n LEN 2 3\n RETURN 2 3", "0 ''");
         Play play = Play.of("main 5\n LOADK 0 'a'\n LOADK 1 'b'\n LOADK 2 'c'\n LOADK 3 'd'\n CONCAT 4 0 3\n CONCAT 4 0 3\n RETURN 4 2");
         play.finish();
         Due.is("two at a time, from the right: cd, bcd, abcd are made, each once", play.counts(3, 4), "67 67");
@@ -95,8 +91,8 @@ public final class InstructionsTest {
     }
 
     private static void compared(String operation, String x, String y, String want) {
-        due("main 3\n LOADK 0 " + x + "\n LOADK 1 " + y + "\n " + operation + " 1 0 1\n JMP 0 2\n LOADBOOL 2 0 0\n RETURN 2 2\n LOADBOOL 2 1 0\n RETURN 2 2", want);
-        due("main 3\n LOADK 0 " + x + "\n LOADK 1 " + y + "\n " + operation + " 0 0 1\n JMP 0 2\n LOADBOOL 2 1 0\n RETURN 2 2\n LOADBOOL 2 0 0\n RETURN 2 2", want);
+        Play.due("main 3\n LOADK 0 " + x + "\n LOADK 1 " + y + "\n " + operation + " 1 0 1\n JMP 0 2\n LOADBOOL 2 0 0\n RETURN 2 2\n LOADBOOL 2 1 0\n RETURN 2 2", want);
+        Play.due("main 3\n LOADK 0 " + x + "\n LOADK 1 " + y + "\n " + operation + " 0 0 1\n JMP 0 2\n LOADBOOL 2 1 0\n RETURN 2 2\n LOADBOOL 2 0 0\n RETURN 2 2", want);
     }
 
     private static void compares() {
@@ -116,26 +112,26 @@ public final class InstructionsTest {
         compared("LT", "'z'", "'\u00ff'", "true");
         compared("LE", "'b'", "'aa'", "false");
         compared("LE", "'a'", "'a'", "true");
-        due("main 3\n LOADK 0 #1\n LT 1 0 'a'\n JMP 0 0\n RETURN 0 1", "error 3");
-        due("main 3\n LOADK 0 true\n LE 1 0 true\n JMP 0 0\n RETURN 0 1", "error 3");
+        Play.due("main 3\n LOADK 0 #1\n LT 1 0 'a'\n JMP 0 0\n RETURN 0 1", "error 3");
+        Play.due("main 3\n LOADK 0 true\n LE 1 0 true\n JMP 0 0\n RETURN 0 1", "error 3");
     }
 
     private static void testsAndSkips() {
         for (String value : new String[] {"nil", "false", "true", "#0", "''"}) {
             boolean truth = !value.equals("nil") && !value.equals("false");
-            due("main 3\n LOADK 0 " + value + "\n TEST 0 0\n JMP 0 2\n LOADK 1 #1\n RETURN 1 2\n LOADK 1 #0\n RETURN 1 2", truth ? "1" : "0");
-            due("main 3\n LOADK 0 " + value + "\n TEST 0 1\n JMP 0 2\n LOADK 1 #1\n RETURN 1 2\n LOADK 1 #0\n RETURN 1 2", truth ? "0" : "1");
+            Play.due("main 3\n LOADK 0 " + value + "\n TEST 0 0\n JMP 0 2\n LOADK 1 #1\n RETURN 1 2\n LOADK 1 #0\n RETURN 1 2", truth ? "1" : "0");
+            Play.due("main 3\n LOADK 0 " + value + "\n TEST 0 1\n JMP 0 2\n LOADK 1 #1\n RETURN 1 2\n LOADK 1 #0\n RETURN 1 2", truth ? "0" : "1");
         }
-        due("main 3\n LOADK 0 #5\n LOADK 1 #6\n TESTSET 1 0 1\n JMP 0 0\n RETURN 1 2", "5");
-        due("main 3\n LOADK 0 #5\n LOADK 1 #6\n TESTSET 1 0 0\n JMP 0 0\n RETURN 1 2", "6");
-        due("main 3\n LOADNIL 0 0\n LOADK 1 #6\n TESTSET 1 0 0\n JMP 0 0\n RETURN 1 2", "nil");
+        Play.due("main 3\n LOADK 0 #5\n LOADK 1 #6\n TESTSET 1 0 1\n JMP 0 0\n RETURN 1 2", "5");
+        Play.due("main 3\n LOADK 0 #5\n LOADK 1 #6\n TESTSET 1 0 0\n JMP 0 0\n RETURN 1 2", "6");
+        Play.due("main 3\n LOADNIL 0 0\n LOADK 1 #6\n TESTSET 1 0 0\n JMP 0 0\n RETURN 1 2", "nil");
         Play play = Play.of("main 3\n TESTSET 1 0 0\n JMP 0 0\n RETURN 1 2");
         play.finish();
         Due.is("a jump behind a test is a step of its own", play.x.count(2), 3);
     }
 
     private static void loop(String from, String to, String by, String want) {
-        due("main 8\n LOADK 0 " + from + "\n LOADK 1 " + to + "\n LOADK 2 " + by + "\n LOADK 4 #0\n FORPREP 0 >next\nbody:\n ADD 4 4 #1\n LT 1 #9 4\n JMP 0 >out\nnext:\n FORLOOP 0 >body\n"
+        Play.due("main 8\n LOADK 0 " + from + "\n LOADK 1 " + to + "\n LOADK 2 " + by + "\n LOADK 4 #0\n FORPREP 0 >next\nbody:\n ADD 4 4 #1\n LT 1 #9 4\n JMP 0 >out\nnext:\n FORLOOP 0 >body\n"
             + "out:\n RETURN 3 3", want);
     }
 
@@ -150,32 +146,32 @@ public final class InstructionsTest {
         loop("'1'", "#2", "#1", "error 3");
         loop("#1", "nil", "#1", "error 3");
         loop("#1", "#2", "'1'", "error 3");
-        due("main 8\n LOADK 0 #1\n LOADK 1 #9\n LOADK 2 'a'\n FORLOOP 0 0\n RETURN 0 1", "error 3");
-        due("main 6\n NEWTABLE 5\n SETTABLE 5 'a' #4\n SETTABLE 5 'b' #5\n GLOBAL 0 'next'\n MOVE 1 5\n LOADNIL 2 0\n JMP 0 >in\nbody:\n SETGLOBAL 'last' 3\n"
+        Play.due("main 8\n LOADK 0 #1\n LOADK 1 #9\n LOADK 2 'a'\n FORLOOP 0 0\n RETURN 0 1", "error 3");
+        Play.due("main 6\n NEWTABLE 5\n SETTABLE 5 'a' #4\n SETTABLE 5 'b' #5\n GLOBAL 0 'next'\n MOVE 1 5\n LOADNIL 2 0\n JMP 0 >in\nbody:\n SETGLOBAL 'last' 3\n"
             + "in:\n TFORCALL 0 1\n TFORLOOP 2 >body\n GLOBAL 4 'last'\n RETURN 2 4", "'b' nil 'b'");
-        due("main 7\n CLOSURE 0 f\n LOADK 1 #3\n LOADK 2 #4\n TFORCALL 0 3\n RETURN 3 4\n function f 2 0 3\n RETURN 0 3\n end", "3 4 nil");
-        due("main 4\n LOADNIL 0 3\n TFORCALL 0 1\n RETURN 0 1", "error 1");
+        Play.due("main 7\n CLOSURE 0 f\n LOADK 1 #3\n LOADK 2 #4\n TFORCALL 0 3\n RETURN 3 4\n function f 2 0 3\n RETURN 0 3\n end", "3 4 nil");
+        Play.due("main 4\n LOADNIL 0 3\n TFORCALL 0 1\n RETURN 0 1", "error 1");
     }
 
     private static void takesFurtherArguments() {
         String f = "function f 1 1 5\n VARARG 1 4\n RETURN 0 5\n end";
-        due("main 6\n CLOSURE 0 f\n LOADK 1 #1\n LOADK 2 #2\n LOADK 3 #3\n CALL 0 4 5\n RETURN 0 5\n" + f, "1 2 3 nil");
-        due("main 6\n CLOSURE 0 f\n CALL 0 1 5\n RETURN 0 5\n" + f, "nil nil nil nil");
-        due("main 6\n VARARG 0 0\n RETURN 0 0", "");
-        due("main 6\n CLOSURE 0 f\n LOADK 1 #1\n LOADK 2 #2\n CALL 0 3 0\n RETURN 0 0\n function f 0 0 4\n VARARG 0 0\n RETURN 0 0\n end", "");
-        due("main 6\n CLOSURE 0 f\n LOADK 1 #1\n LOADK 2 #2\n LOADK 3 #3\n CALL 0 4 0\n RETURN 0 0\n function f 1 1 4\n LOADK 1 #9\n VARARG 2 0\n RETURN 0 0\n end", "1 9 2 3");
-        due("main 6\n CLOSURE 0 f\n LOADK 1 #1\n LOADK 2 #2\n CALL 0 3 2\n LEN 1 0\n GETTABLE 2 0 #5\n RETURN 1 3\n"
+        Play.due("main 6\n CLOSURE 0 f\n LOADK 1 #1\n LOADK 2 #2\n LOADK 3 #3\n CALL 0 4 5\n RETURN 0 5\n" + f, "1 2 3 nil");
+        Play.due("main 6\n CLOSURE 0 f\n CALL 0 1 5\n RETURN 0 5\n" + f, "nil nil nil nil");
+        Play.due("main 6\n VARARG 0 0\n RETURN 0 0", "");
+        Play.due("main 6\n CLOSURE 0 f\n LOADK 1 #1\n LOADK 2 #2\n CALL 0 3 0\n RETURN 0 0\n function f 0 0 4\n VARARG 0 0\n RETURN 0 0\n end", "");
+        Play.due("main 6\n CLOSURE 0 f\n LOADK 1 #1\n LOADK 2 #2\n LOADK 3 #3\n CALL 0 4 0\n RETURN 0 0\n function f 1 1 4\n LOADK 1 #9\n VARARG 2 0\n RETURN 0 0\n end", "1 9 2 3");
+        Play.due("main 6\n CLOSURE 0 f\n LOADK 1 #1\n LOADK 2 #2\n CALL 0 3 2\n LEN 1 0\n GETTABLE 2 0 #5\n RETURN 1 3\n"
             + "function f 0 1 4\n NEWTABLE 0\n LOADK 1 #7\n VARARG 2 0\n SETLIST 0 0 3\n SETTABLE 0 #1 #0\n SETTABLE 0 #2 #0\n RETURN 0 2\n end", "5 2");
     }
 
     private static void sharesVariables() {
         String two = "function get 0 0 2 r0\n GETUPVAL 0 0\n RETURN 0 2\n end\n function add 0 0 2 r0\n GETUPVAL 0 0\n ADD 0 0 #1\n SETUPVAL 0 0\n RETURN 0 1\n end";
-        due("main 4\n LOADK 0 #1\n CLOSURE 1 get\n CLOSURE 2 add\n CALL 2 1 1\n CALL 1 1 2\n RETURN 0 2\n" + two, "2");
-        due("main 4\n LOADK 0 #1\n CLOSURE 1 get\n CLOSURE 2 add\n JMP 1 0\n LOADK 0 #50\n CALL 2 1 1\n CALL 1 1 2\n RETURN 0 2\n" + two, "50");
-        due("main 4\n LOADK 0 #1\n CLOSURE 1 get\n CLOSURE 2 add\n JMP 1 0\n LOADK 0 #50\n CALL 2 1 1\n CALL 1 1 2\n RETURN 1 2\n" + two, "2");
-        due("main 4\n LOADK 0 #1\n CLOSURE 1 get\n CLOSURE 2 add\n JMP 2 0\n LOADK 0 #50\n CALL 2 1 1\n CALL 1 1 2\n RETURN 1 2\n" + two, "51");
-        due("main 5\n LOADK 0 #1\n CLOSURE 1 get\n JMP 1 0\n CLOSURE 2 add\n CALL 2 1 1\n CALL 1 1 2\n RETURN 0 2\n" + two, "2");
-        due("main 3\n CLOSURE 0 outer\n LOADK 1 #5\n CALL 0 2 2\n CALL 0 1 2\n RETURN 0 2\n"
+        Play.due("main 4\n LOADK 0 #1\n CLOSURE 1 get\n CLOSURE 2 add\n CALL 2 1 1\n CALL 1 1 2\n RETURN 0 2\n" + two, "2");
+        Play.due("main 4\n LOADK 0 #1\n CLOSURE 1 get\n CLOSURE 2 add\n JMP 1 0\n LOADK 0 #50\n CALL 2 1 1\n CALL 1 1 2\n RETURN 0 2\n" + two, "50");
+        Play.due("main 4\n LOADK 0 #1\n CLOSURE 1 get\n CLOSURE 2 add\n JMP 1 0\n LOADK 0 #50\n CALL 2 1 1\n CALL 1 1 2\n RETURN 1 2\n" + two, "2");
+        Play.due("main 4\n LOADK 0 #1\n CLOSURE 1 get\n CLOSURE 2 add\n JMP 2 0\n LOADK 0 #50\n CALL 2 1 1\n CALL 1 1 2\n RETURN 1 2\n" + two, "51");
+        Play.due("main 5\n LOADK 0 #1\n CLOSURE 1 get\n JMP 1 0\n CLOSURE 2 add\n CALL 2 1 1\n CALL 1 1 2\n RETURN 0 2\n" + two, "2");
+        Play.due("main 3\n CLOSURE 0 outer\n LOADK 1 #5\n CALL 0 2 2\n CALL 0 1 2\n RETURN 0 2\n"
             + "function outer 1 0 2\n CLOSURE 1 middle\n TAILCALL 1 1\n function middle 0 0 2 r0\n CLOSURE 0 inner\n RETURN 0 2\n"
             + "function inner 0 0 2 u0\n GETUPVAL 0 0\n RETURN 0 2\n end\n end\n end", "5");
     }

@@ -12,15 +12,11 @@ public final class TablesTest {
         Due.end();
     }
 
-    private static void due(String program, String want) {
-        Due.is(program.replace('\n', ';'), Play.answer(program), want);
-    }
-
     private static void readsAndWrites() {
-        due("main 4\n NEWTABLE 0\n SETTABLE 0 'a' #1\n SETTABLE 0 'a' #2\n GETTABLE 1 0 'a'\n GETTABLE 2 0 'b'\n RETURN 1 3", "2 nil");
-        due("main 4\n NEWTABLE 0\n GETTABLE 1 0 nil\n RETURN 1 2", "nil");
-        due("main 4\n NEWTABLE 0\n SETTABLE 0 nil #1\n RETURN 0 1", "error 6");
-        due("main 4\n NEWTABLE 0\n SETTABLE 0 nil nil\n RETURN 0 1", "error 6");
+        Play.due("main 4\n NEWTABLE 0\n SETTABLE 0 'a' #1\n SETTABLE 0 'a' #2\n GETTABLE 1 0 'a'\n GETTABLE 2 0 'b'\n RETURN 1 3", "2 nil");
+        Play.due("main 4\n NEWTABLE 0\n GETTABLE 1 0 nil\n RETURN 1 2", "nil");
+        Play.due("main 4\n NEWTABLE 0\n SETTABLE 0 nil #1\n RETURN 0 1", "error 6");
+        Play.due("main 4\n NEWTABLE 0\n SETTABLE 0 nil nil\n RETURN 0 1", "error 6");
         Play play = Play.of("main 4\n NEWTABLE 0\n SETTABLE 0 'a' nil\n RETURN 0 1");
         play.finish();
         Due.is("nil where there is no entry takes no room", play.x.count(7), 61);
@@ -50,40 +46,40 @@ public final class TablesTest {
         Play one = Play.of(four + "SETTABLE 0 'a' nil\n SETTABLE 0 'e' #5\n GETTABLE 1 0 'e'\n RETURN 1 2");
         Due.is("a new one behind a dead one", one.finish(), "5");
         Due.is("with more than half taken the room is doubled", one.x.count(6), 40);
-        due(four + "SETTABLE 0 'b' nil\n GLOBAL 1 'next'\n MOVE 2 0\n LOADK 3 'b'\n CALL 1 3 3\n RETURN 1 3", "'c' 3");
-        due(four + "SETTABLE 0 'b' nil\n SETTABLE 0 'b' #7\n GLOBAL 1 'next'\n MOVE 2 0\n LOADK 3 'a'\n CALL 1 3 3\n RETURN 1 3", "'b' 7");
+        Play.due(four + "SETTABLE 0 'b' nil\n GLOBAL 1 'next'\n MOVE 2 0\n LOADK 3 'b'\n CALL 1 3 3\n RETURN 1 3", "'c' 3");
+        Play.due(four + "SETTABLE 0 'b' nil\n SETTABLE 0 'b' #7\n GLOBAL 1 'next'\n MOVE 2 0\n LOADK 3 'a'\n CALL 1 3 3\n RETURN 1 3", "'b' 7");
     }
 
     private static void keepsItsOrder() {
         String walk = "GLOBAL 1 'next'\n MOVE 2 0\n LOADNIL 3 0\n JMP 0 >in\nbody:\n MOVE 6 4\n CONCAT 5 5 6\nin:\n TFORCALL 1 1\n TFORLOOP 3 >body\n RETURN 5 2";
-        due("main 8\n NEWTABLE 0\n LOADK 5 ''\n SETTABLE 0 'z' #1\n SETTABLE 0 #3 #1\n SETTABLE 0 'a' #1\n SETTABLE 0 #1 #1\n SETTABLE 0 #-5 #1\n SETTABLE 0 'q' #1\n" + walk, "'z3a1-5q'");
-        due("main 8\n NEWTABLE 0\n LOADK 5 ''\n SETTABLE 0 'z' #1\n SETTABLE 0 #3 #1\n SETTABLE 0 'a' #1\n SETTABLE 0 #1 #1\n SETTABLE 0 'z' nil\n SETTABLE 0 #1 nil\n"
+        Play.due("main 8\n NEWTABLE 0\n LOADK 5 ''\n SETTABLE 0 'z' #1\n SETTABLE 0 #3 #1\n SETTABLE 0 'a' #1\n SETTABLE 0 #1 #1\n SETTABLE 0 #-5 #1\n SETTABLE 0 'q' #1\n" + walk, "'z3a1-5q'");
+        Play.due("main 8\n NEWTABLE 0\n LOADK 5 ''\n SETTABLE 0 'z' #1\n SETTABLE 0 #3 #1\n SETTABLE 0 'a' #1\n SETTABLE 0 #1 #1\n SETTABLE 0 'z' nil\n SETTABLE 0 #1 nil\n"
             + "SETTABLE 0 'n' #1\n SETTABLE 0 'z' #1\n" + walk, "'3anz'");
-        due("main 5\n NEWTABLE 0\n GLOBAL 1 'next'\n MOVE 2 0\n CALL 1 2 0\n RETURN 1 0", "nil");
-        due("main 5\n NEWTABLE 0\n SETTABLE 0 #1 #1\n GLOBAL 1 'next'\n MOVE 2 0\n LOADK 3 #1\n CALL 1 3 0\n RETURN 1 0", "nil");
-        due("main 5\n NEWTABLE 0\n SETTABLE 0 #1 #1\n GLOBAL 1 'next'\n MOVE 2 0\n LOADK 3 #2\n CALL 1 3 0\n RETURN 1 0", "error 6");
+        Play.due("main 5\n NEWTABLE 0\n GLOBAL 1 'next'\n MOVE 2 0\n CALL 1 2 0\n RETURN 1 0", "nil");
+        Play.due("main 5\n NEWTABLE 0\n SETTABLE 0 #1 #1\n GLOBAL 1 'next'\n MOVE 2 0\n LOADK 3 #1\n CALL 1 3 0\n RETURN 1 0", "nil");
+        Play.due("main 5\n NEWTABLE 0\n SETTABLE 0 #1 #1\n GLOBAL 1 'next'\n MOVE 2 0\n LOADK 3 #2\n CALL 1 3 0\n RETURN 1 0", "error 6");
     }
 
     private static void measuresTheLeastBorder() {
         String three = "main 5\n NEWTABLE 0\n SETTABLE 0 #1 #1\n SETTABLE 0 #2 #1\n SETTABLE 0 #4 #1\n LEN 1 0\n ";
-        due(three + "RETURN 1 2", "2");
-        due(three + "SETTABLE 0 #3 #1\n LEN 2 0\n RETURN 1 3", "2 4");
-        due(three + "SETTABLE 0 #3 #1\n LEN 2 0\n SETTABLE 0 #2 nil\n LEN 3 0\n SETTABLE 0 #2 #9\n LEN 4 0\n RETURN 2 4", "4 1 4");
-        due(three + "SETTABLE 0 #1 nil\n LEN 2 0\n RETURN 2 2", "0");
-        due("main 5\n NEWTABLE 0\n SETTABLE 0 #0 #1\n SETTABLE 0 #2 #1\n LEN 1 0\n RETURN 1 2", "0");
+        Play.due(three + "RETURN 1 2", "2");
+        Play.due(three + "SETTABLE 0 #3 #1\n LEN 2 0\n RETURN 1 3", "2 4");
+        Play.due(three + "SETTABLE 0 #3 #1\n LEN 2 0\n SETTABLE 0 #2 nil\n LEN 3 0\n SETTABLE 0 #2 #9\n LEN 4 0\n RETURN 2 4", "4 1 4");
+        Play.due(three + "SETTABLE 0 #1 nil\n LEN 2 0\n RETURN 2 2", "0");
+        Play.due("main 5\n NEWTABLE 0\n SETTABLE 0 #0 #1\n SETTABLE 0 #2 #1\n LEN 1 0\n RETURN 1 2", "0");
     }
 
     private static void writesLists() {
-        due("main 6\n NEWTABLE 0\n LOADK 1 #5\n LOADNIL 2 0\n LOADK 3 #7\n SETLIST 0 3 10\n GETTABLE 1 0 #10\n GETTABLE 2 0 #11\n GETTABLE 3 0 #12\n RETURN 1 4", "5 nil 7");
-        due("main 6\n LOADK 0 #1\n SETLIST 0 3 1\n RETURN 0 1", "error 2");
-        due("main 6\n NEWTABLE 0\n NEWTABLE 1\n GLOBAL 2 'print'\n SETTABLE 1 '__newindex' 2\n GLOBAL 2 'setmetatable'\n MOVE 3 0\n MOVE 4 1\n CALL 2 3 1\n LOADK 1 #8\n SETLIST 0 1 1\n"
+        Play.due("main 6\n NEWTABLE 0\n LOADK 1 #5\n LOADNIL 2 0\n LOADK 3 #7\n SETLIST 0 3 10\n GETTABLE 1 0 #10\n GETTABLE 2 0 #11\n GETTABLE 3 0 #12\n RETURN 1 4", "5 nil 7");
+        Play.due("main 6\n LOADK 0 #1\n SETLIST 0 3 1\n RETURN 0 1", "error 2");
+        Play.due("main 6\n NEWTABLE 0\n NEWTABLE 1\n GLOBAL 2 'print'\n SETTABLE 1 '__newindex' 2\n GLOBAL 2 'setmetatable'\n MOVE 3 0\n MOVE 4 1\n CALL 2 3 1\n LOADK 1 #8\n SETLIST 0 1 1\n"
             + "GETTABLE 1 0 #1\n RETURN 1 2", "8");
     }
 
     private static void takesKeysOfEachKind() {
-        due("main 9\n NEWTABLE 0\n NEWTABLE 1\n NEWTABLE 2\n CLOSURE 3 f\n GLOBAL 4 'print'\n SETTABLE 0 true #1\n SETTABLE 0 false #2\n SETTABLE 0 1 #3\n SETTABLE 0 2 #4\n SETTABLE 0 3 #5\n SETTABLE 0 4 #6\n"
+        Play.due("main 9\n NEWTABLE 0\n NEWTABLE 1\n NEWTABLE 2\n CLOSURE 3 f\n GLOBAL 4 'print'\n SETTABLE 0 true #1\n SETTABLE 0 false #2\n SETTABLE 0 1 #3\n SETTABLE 0 2 #4\n SETTABLE 0 3 #5\n SETTABLE 0 4 #6\n"
             + "SETTABLE 0 '1' #7\n SETTABLE 0 #1 #8\n GETTABLE 5 0 true\n GETTABLE 6 0 1\n GETTABLE 7 0 4\n GETTABLE 8 0 #1\n RETURN 5 5\n function f 0 0 2\n RETURN 0 1\n end", "1 3 6 8");
-        due("main 5\n NEWTABLE 0\n SETTABLE 0 #9223372036854775807 #1\n SETTABLE 0 #-9223372036854775808 #2\n GETTABLE 1 0 #9223372036854775807\n GETTABLE 2 0 #-9223372036854775808\n RETURN 1 3", "1 2");
+        Play.due("main 5\n NEWTABLE 0\n SETTABLE 0 #9223372036854775807 #1\n SETTABLE 0 #-9223372036854775808 #2\n GETTABLE 1 0 #9223372036854775807\n GETTABLE 2 0 #-9223372036854775808\n RETURN 1 3", "1 2");
     }
 
     /** Many short lived tables beside one that grows: all of the pool is used several times. */

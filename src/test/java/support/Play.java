@@ -14,6 +14,11 @@ final class Play {
         return of(program).finish();
     }
 
+    /** A program that is run to its end is to answer this. */
+    static void due(String program, String want) {
+        Due.is(program.replace('\n', ';'), answer(program), want);
+    }
+
     void put(byte[] bytes) {
         int start = x.count(0);
         for (int i = 0; i < bytes.length; i += 20) {
