@@ -83,6 +83,11 @@ public final class CollectionTest {
         String f = "\n function f 0 0 4 u0\n NEWTABLE 0\n NEWTABLE 1\n GLOBAL 2 'collect'\n %s\n end";
         Due.is("a frame's registers", Play.answer("main 4\n CLOSURE 0 f\n CALL 0 1 2\n RETURN 0 2" + String.format(f, "CALL 2 1 2\n RETURN 2 2")), "63");
         Due.is("not of a frame that is called in place of", Play.answer("main 4\n CLOSURE 0 f\n CALL 0 1 2\n RETURN 0 2" + String.format(f, "TAILCALL 2 1")), "61");
+        Due.is("nor what is given to collect itself, which makes nothing", Play.answer("main 4\n GLOBAL 0 'collect'\n NEWTABLE 1\n TAILCALL 0 2"), "58");
+        String none = "\n function none 0 0 4 u0\n GLOBAL 0 'collect'\n CALL 0 1 2\n RETURN 0 2\n end\n function g 0 0 4\n NEWTABLE 0\n RETURN 0 2\n end";
+        Due.is("nor an open row that has been used for arguments that none takes", Play.answer("main 4\n CLOSURE 0 none\n CLOSURE 1 g\n CALL 1 1 0\n CALL 0 0 2\n RETURN 0 2" + none), "62");
+        Due.is("nor an error that is forgotten", Play.answer("main 4\n CLOSURE 0 g\n CALL 0 1 1\n GLOBAL 0 'collect'\n CALL 0 1 2\n RETURN 0 2\n"
+            + "function g 0 0 4 u0\n GLOBAL 0 'pcall'\n GLOBAL 1 'error'\n NEWTABLE 2\n CALL 0 3 1\n RETURN 0 1\n end"), "60");
         Due.is("main in place of itself", Play.answer("main 4\n NEWTABLE 1\n GLOBAL 0 'collect'\n TAILCALL 0 1"), "58");
     }
 

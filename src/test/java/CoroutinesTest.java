@@ -9,6 +9,7 @@ public final class CoroutinesTest {
         givesWayInPlaceOfAFrame();
         beginsWithBuiltInFunctions();
         keepsVariablesShared();
+        keepsValuesOfVariablesThatWereShared();
         limitsHowMany();
         limitsFramesOfEachAlone();
         Due.end();
@@ -102,6 +103,12 @@ public final class CoroutinesTest {
         String begin = "main 8\n GLOBAL 0 'wrap'\n CLOSURE 1 f\n CALL 0 2 2\n MOVE 1 0\n CALL 1 1 1\n GLOBAL 1 'add'\n CALL 1 1 1\n GLOBAL 1 'get'\n CALL 1 1 2\n";
         Play.due(begin + "MOVE 2 0\n CALL 2 1 2\n RETURN 1 3\n" + f, "2 2");
         Play.due(begin + "LOADNIL 0 0\n GLOBAL 2 'collect'\n CALL 2 1 1\n NEWTABLE 2\n GLOBAL 3 'create'\n GLOBAL 4 'print'\n CALL 3 2 1\n GLOBAL 2 'add'\n CALL 2 1 1\n GLOBAL 2 'get'\n CALL 2 1 2\n RETURN 1 3\n" + f, "2 3");
+    }
+
+    private static void keepsValuesOfVariablesThatWereShared() {
+        Play.due("main 8\n GLOBAL 0 'wrap'\n CLOSURE 1 f\n CALL 0 2 2\n CALL 0 1 1\n LOADNIL 0 1\n GLOBAL 2 'collect'\n CALL 2 1 2\n NEWTABLE 3\n NEWTABLE 4\n GLOBAL 0 'get'\n CALL 0 1 2\n GETTABLE 0 0 'x'\n MOVE 1 2\n RETURN 0 3\n"
+            + "function f 0 0 4 u0\n NEWTABLE 0\n SETTABLE 0 'x' #5\n CLOSURE 1 get\n SETGLOBAL 'get' 1\n GLOBAL 1 'yield'\n CALL 1 1 1\n RETURN 0 2\n function get 0 0 2 r0\n GETUPVAL 0 0\n RETURN 0 2\n end\n end",
+            "5 65");
     }
 
     private static void limitsHowMany() {

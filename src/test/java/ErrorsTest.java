@@ -6,6 +6,8 @@ public final class ErrorsTest {
         endTheProgram();
         areAnyValues();
         areNotCaughtWhenAllIsMade();
+        leaveJustSoMuchToBeMade();
+        comeFromVariablesAndClosures();
         comeFromWhatMakesTooMuch();
         Due.end();
     }
@@ -54,9 +56,32 @@ public final class ErrorsTest {
         Play rooms = Play.of("main 4\n GLOBAL 0 'pcall'\n CLOSURE 1 f\n CALL 0 2 0\n RETURN 0 0\n function f 0 0 3\nbody:\n NEWTABLE 0\n SETTABLE 0 #1 #1\n SETTABLE 0 #2 #1\n SETTABLE 0 #3 #1\n SETTABLE 0 #4 #1\n SETTABLE 0 #5 #1\n JMP 0 >body\n end");
         Due.is("room", rooms.finish(), "error 11");
         Due.is("room made", rooms.x.count(7), 61 + (300_000 - 61) / 12 * 12 + 4);
-        Play closures = Play.of("main 4\n GLOBAL 0 'pcall'\n CLOSURE 1 f\n CALL 0 2 0\n RETURN 0 0\n function f 0 0 3\nbody:\n CLOSURE 1 g\n JMP 0 >body\n function g 0 0 2 r0 r0 r0 r0 r0 r0 r0\n RETURN 0 1\n end\n end");
+        Play closures = Play.of("main 4\n GLOBAL 0 'pcall'\n CLOSURE 1 f\n CALL 0 2 0\n RETURN 0 0\n function f 0 0 3 u0 u0 u0\nbody:\n CLOSURE 1 g\n JMP 0 >body\n function g 0 0 2 r0 r0 r0 r0 r0 r0 r0\n RETURN 0 1\n end\n end");
         Due.is("upvalues", closures.finish(), "error 11");
-        Due.is("upvalues made", closures.x.count(7), 61 + (300_000 - 61) / 7 * 7);
+        Due.is("upvalues made", closures.x.count(7), 300_000);
+    }
+
+    /** "a" doubled 17 times takes 262,143 bytes, the last string and k of its bytes 131,072 + 2 * k more. */
+    private static void leaveJustSoMuchToBeMade() {
+        int k = (400_000 - 335 - 262_143 - 131_072) / 2;
+        String program = "main 8\n LOADK 0 'a'\n LOADK 1 #1\n LOADK 2 #17\n LOADK 3 #1\n FORPREP 1 >next\nbody:\n MOVE 5 0\n MOVE 6 0\n CONCAT 0 5 6\nnext:\n FORLOOP 1 >body\n"
+            + "GLOBAL 1 'sub'\n MOVE 2 0\n LOADK 3 #1\n LOADK 4 #%d\n CALL 1 4 2\n CONCAT 0 0 1\n LEN 0 0\n RETURN 0 2";
+        Play most = Play.of(String.format(program, k));
+        Due.is("just 400,000 bytes", most.finish(), Long.toString(131_072 + k));
+        Due.is("bytes made", most.x.count(8), 400_000);
+        Due.is("two more", Play.answer(String.format(program, k + 1)), "error 11");
+    }
+
+    /** Where the limit is reached while a variable or a closure is made. */
+    private static void comeFromVariablesAndClosures() {
+        String fill = "main 8\n NEWTABLE 0\n LOADK 1 #1\n LOADK 2 #%d\n LOADK 3 #1\n FORPREP 1 >next\nbody:\n NEWTABLE 5\n SETTABLE 0 4 5\nnext:\n FORLOOP 1 >body\n CLOSURE 6 f\n RETURN 6 2\n function f 0 0 2 r1 r2\n RETURN 0 1\n end";
+        String[] want = {"function:199", "error 10", "error 10", "error 10", "error 10"};
+        for (int i = 0; i < want.length; i++) {
+            Play play = Play.of(String.format(fill, 136 + i));
+            play.x.limit(200);
+            Due.is("two variables and a closure beside " + (136 + i) + " tables", play.finish(), want[i]);
+            Due.is("existing", play.x.count(3), Math.min(200, 197 + i + (i == 0 ? 3 : i == 1 ? 2 : i == 2 ? 1 : 0)));
+        }
     }
 
     private static void comeFromWhatMakesTooMuch() {

@@ -157,6 +157,7 @@ public final class InstructionsTest {
         String f = "function f 1 1 5\n VARARG 1 4\n RETURN 0 5\n end";
         Play.due("main 6\n CLOSURE 0 f\n LOADK 1 #1\n LOADK 2 #2\n LOADK 3 #3\n CALL 0 4 5\n RETURN 0 5\n" + f, "1 2 3 nil");
         Play.due("main 6\n CLOSURE 0 f\n CALL 0 1 5\n RETURN 0 5\n" + f, "nil nil nil nil");
+        Play.due("main 6\n CLOSURE 0 f\n LOADK 1 #1\n LOADK 2 #2\n LOADK 3 #3\n LOADK 4 #4\n CALL 0 5 1\n CLOSURE 0 f\n LOADK 1 #1\n LOADK 2 #2\n CALL 0 3 5\n RETURN 0 5\n" + f, "1 2 nil nil");
         Play.due("main 6\n VARARG 0 0\n RETURN 0 0", "");
         Play.due("main 6\n CLOSURE 0 f\n LOADK 1 #1\n LOADK 2 #2\n CALL 0 3 0\n RETURN 0 0\n function f 0 0 4\n VARARG 0 0\n RETURN 0 0\n end", "");
         Play.due("main 6\n CLOSURE 0 f\n LOADK 1 #1\n LOADK 2 #2\n LOADK 3 #3\n CALL 0 4 0\n RETURN 0 0\n function f 1 1 4\n LOADK 1 #9\n VARARG 2 0\n RETURN 0 0\n end", "1 9 2 3");
@@ -165,6 +166,7 @@ public final class InstructionsTest {
     }
 
     private static void sharesVariables() {
+        Play.due("main 4\n CLOSURE 0 f\n CLOSURE 1 f\n NEWTABLE 2\n RETURN 0 4\n function f 0 0 2 r2 u0 r3\n RETURN 0 1\n end", "function:62 function:63 table:64");
         String two = "function get 0 0 2 r0\n GETUPVAL 0 0\n RETURN 0 2\n end\n function add 0 0 2 r0\n GETUPVAL 0 0\n ADD 0 0 #1\n SETUPVAL 0 0\n RETURN 0 1\n end";
         Play.due("main 4\n LOADK 0 #1\n CLOSURE 1 get\n CLOSURE 2 add\n CALL 2 1 1\n CALL 1 1 2\n RETURN 0 2\n" + two, "2");
         Play.due("main 4\n LOADK 0 #1\n CLOSURE 1 get\n CLOSURE 2 add\n JMP 1 0\n LOADK 0 #50\n CALL 2 1 1\n CALL 1 1 2\n RETURN 0 2\n" + two, "50");

@@ -53,6 +53,7 @@ public final class MetamethodsTest {
         String yes = "CLOSURE 5 f\n SETTABLE 1 '__eq' 5\n SETTABLE 1 '__lt' 5\n SETTABLE 1 '__le' 5";
         String f = "\n function f 2 0 3\n LOADK 0 #0\n RETURN 0 2\n end";
         Play.due(with(yes, "NEWTABLE 6\n EQ 1 6 0\n JMP 0 1\n RETURN 0 1\n LT 1 0 6\n JMP 0 1\n RETURN 0 1\n LE 1 #1 0\n JMP 0 1\n RETURN 0 1\n LOADK 5 #1\n RETURN 5 2" + f), "1");
+        Play.due(with(yes, "EQ 0 0 #1\n JMP 0 1\n RETURN 0 1\n EQ 0 'a' 0\n JMP 0 1\n RETURN 0 1\n LOADK 5 #1\n RETURN 5 2" + f), "1");
         String no = "\n function f 2 0 3\n RETURN 0 1\n end";
         Play.due(with(yes, "NEWTABLE 6\n EQ 0 6 0\n JMP 0 1\n RETURN 0 1\n LT 0 0 'a'\n JMP 0 1\n RETURN 0 1\n LOADK 5 #1\n RETURN 5 2" + no), "1");
         Play.due(with(yes, "EQ 1 0 0\n JMP 0 1\n RETURN 0 1\n EQ 0 0 #1\n JMP 0 1\n RETURN 0 1\n LOADK 5 #1\n RETURN 5 2" + no), "1");
