@@ -4,11 +4,15 @@ public final class CollectionTest {
         keepsWhatRegistersReach();
         keepsKeysOfDeadEntries();
         keepsWhatCoroutinesReach();
+        keepsRunningCoroutines();
+        letsGoOfWhatHasBeenHandedOn();
+        letsGoOfWhatAnErrorLeft();
         keepsOpenRows();
         keepsWhatIsInHand();
         letsGoOfWhatIsClosedOrLeft();
         makesStringsAgain();
         comesBeforeTheLimit();
+        comesBeforeTooMuchRoom();
         isCalledByPrograms();
         isNotNoticed();
         Due.end();
@@ -49,6 +53,33 @@ public final class CollectionTest {
         kept("main 8\n GLOBAL 0 'wrap'\n CLOSURE 1 f\n CALL 0 2 2\n LOADNIL 1 6" + COLLECT + f, 3);
         Play inner = Play.of("main 8\n GLOBAL 0 'wrap'\n CLOSURE 1 g\n CALL 0 2 2\n LOADNIL 1 6\n TAILCALL 0 1\n function g 0 0 2 u0\n GLOBAL 0 'collect'\n CALL 0 1 2\n RETURN 0 2\n end");
         Due.is("the waiting wrapper, the running coroutine, its closure, the main's variable, but main's closure no more", inner.finish(), "62");
+    }
+
+    private static void keepsRunningCoroutines() {
+        Play.due("main 8\n GLOBAL 0 'resume'\n GLOBAL 1 'create'\n CLOSURE 2 g\n CALL 1 2 2\n TAILCALL 0 2\n"
+            + "function g 0 0 4 u0\n NEWTABLE 0\n SETTABLE 0 #1 #3\n GLOBAL 1 'collect'\n CALL 1 1 2\n NEWTABLE 2\n NEWTABLE 3\n GETTABLE 0 0 #1\n RETURN 0 3\n end", "true 3 62");
+    }
+
+    /** What a __concat is called with waits no more; what is still to be joined does. */
+    private static void letsGoOfWhatHasBeenHandedOn() {
+        String program = "main 10\n NEWTABLE 0\n NEWTABLE 1\n CLOSURE 2 f\n SETTABLE 1 '__concat' 2\n GLOBAL 2 'setmetatable'\n MOVE 3 0\n MOVE 4 1\n CALL 2 3 1\n LOADNIL 2 6\n"
+            + "MOVE 4 0\n LOADK 5 #12\n LOADK 6 #34\n CONCAT 7 4 6\n RETURN 7 2\n function f %d 0 3 u0\n GLOBAL 2 'collect'\n CALL 2 1 2\n RETURN 2 2\n end";
+        Play.due(String.format(program, 0), "63");
+        Play.due(String.format(program, 2), "64");
+    }
+
+    private static void letsGoOfWhatAnErrorLeft() {
+        Play play = Play.of("main 4\n GLOBAL 0 'pcall'\n GLOBAL 1 'error'\n NEWTABLE 2\n CALL 0 3 1\n LOADNIL 2 0\n RETURN 0 1");
+        play.x.run(5);
+        Due.is("an error that is forgotten", play.x.collect(), 60);
+        Play row = Play.of("main 4\n GLOBAL 0 'pcall'\n CLOSURE 1 f\n CALL 0 2 1\n LOADNIL 1 1\n RETURN 0 1\n function f 0 0 4\n LOADNIL 0 0\n LOADK 1 #1\n CLOSURE 2 g\n CALL 2 1 0\n CALL 0 0 1\n RETURN 0 1\n"
+            + "function g 0 0 250\n NEWTABLE 0\n RETURN 0 251\n end\n end");
+        row.x.run(3 + 6 + 2);
+        Due.is("an open row that was too long", row.x.collect(), 60);
+        Play ended = Play.of("main 4\n GLOBAL 0 'create'\n CLOSURE 1 f\n CALL 0 2 2\n GLOBAL 1 'resume'\n MOVE 2 0\n CALL 1 2 1\n LOADNIL 1 1\n RETURN 0 1\n"
+            + "function f 0 0 4\n CLOSURE 1 g\n ADD 1 1 1\n RETURN 0 1\n function g 0 0 2 r0\n RETURN 0 1\n end\n end");
+        ended.x.run(9);
+        Due.is("the variables of a coroutine that ended by an error", ended.x.collect(), 61);
     }
 
     private static void keepsOpenRows() {
@@ -109,6 +140,23 @@ public final class CollectionTest {
         rooms.x.limit(4000);
         rooms.finish();
         Due.is("made", rooms.x.count(4), 16_060);
+    }
+
+    /** Rooms of 16,384, 8,192 twice, 4,096 and 2,048 beside the globals' 32, then rooms of 4 up to 40,000. */
+    private static void comesBeforeTooMuchRoom() {
+        StringBuilder text = new StringBuilder("main 14\n");
+        int[] entries = {8193, 4097, 4097, 2049, 1025};
+        for (int i = 0; i < entries.length; i++) {
+            text.append("NEWTABLE ").append(i).append("\n LOADK 6 #1\n LOADK 7 #").append(entries[i]).append("\n LOADK 8 #1\n FORPREP 6 >n").append(i).append("\nb").append(i)
+                .append(":\n SETTABLE ").append(i).append(" 9 9\nn").append(i).append(":\n FORLOOP 6 >b").append(i).append("\n");
+        }
+        text.append("LOADK 6 #1\n LOADK 7 #%d\n LOADK 8 #1\n LOADNIL 10 0\n FORPREP 6 >last\nmore:\n NEWTABLE 11\n SETTABLE 11 #1 10\n SETTABLE 11 #2 true\n MOVE 10 11\nlast:\n FORLOOP 6 >more\n RETURN 6 2");
+        Play just = Play.of(String.format(text.toString(), 264));
+        just.finish();
+        Due.is("rooms and collections", just.x.count(6) + " " + just.x.count(5) + " " + just.results(), "40000 0 265");
+        Play over = Play.of(String.format(text.toString(), 265));
+        Due.is("one more", over.finish(), "error 10");
+        Due.is("rooms and collections", over.x.count(6) + " " + over.x.count(5), "40000 1");
     }
 
     private static void isCalledByPrograms() {

@@ -109,6 +109,9 @@ public final class CoroutinesTest {
         Play.due("main 8\n GLOBAL 0 'wrap'\n CLOSURE 1 f\n CALL 0 2 2\n CALL 0 1 1\n LOADNIL 0 1\n GLOBAL 2 'collect'\n CALL 2 1 2\n NEWTABLE 3\n NEWTABLE 4\n GLOBAL 0 'get'\n CALL 0 1 2\n GETTABLE 0 0 'x'\n MOVE 1 2\n RETURN 0 3\n"
             + "function f 0 0 4 u0\n NEWTABLE 0\n SETTABLE 0 'x' #5\n CLOSURE 1 get\n SETGLOBAL 'get' 1\n GLOBAL 1 'yield'\n CALL 1 1 1\n RETURN 0 2\n function get 0 0 2 r0\n GETUPVAL 0 0\n RETURN 0 2\n end\n end",
             "5 65");
+        Play.due("main 8\n GLOBAL 0 'resume'\n GLOBAL 1 'create'\n CLOSURE 2 f\n CALL 1 2 2\n CALL 0 2 1\n GLOBAL 0 'resume'\n GLOBAL 1 'create'\n CLOSURE 2 g\n CALL 1 2 2\n CALL 0 2 1\n GLOBAL 0 'get'\n CALL 0 1 2\n RETURN 0 2\n"
+            + "function f 0 0 4 u0\n LOADK 0 #8\n CLOSURE 1 get\n SETGLOBAL 'get' 1\n ADD 1 1 1\n RETURN 0 2\n function get 0 0 2 r0\n GETUPVAL 0 0\n RETURN 0 2\n end\n end\n"
+            + "function g 0 0 4\n LOADK 0 #9\n RETURN 0 1\n end", "8");
     }
 
     private static void limitsHowMany() {

@@ -56,6 +56,10 @@ public final class ErrorsTest {
         Play rooms = Play.of("main 4\n GLOBAL 0 'pcall'\n CLOSURE 1 f\n CALL 0 2 0\n RETURN 0 0\n function f 0 0 3\nbody:\n NEWTABLE 0\n SETTABLE 0 #1 #1\n SETTABLE 0 #2 #1\n SETTABLE 0 #3 #1\n SETTABLE 0 #4 #1\n SETTABLE 0 #5 #1\n JMP 0 >body\n end");
         Due.is("room", rooms.finish(), "error 11");
         Due.is("room made", rooms.x.count(7), 61 + (300_000 - 61) / 12 * 12 + 4);
+        Play exactly = Play.of("main 4\n CLOSURE 1 f\n CALL 1 1 0\n RETURN 0 0\n function f 0 0 3 u0 u0 u0\nbody:\n NEWTABLE 0\n SETTABLE 0 #1 #1\n SETTABLE 0 #2 #1\n SETTABLE 0 #3 #1\n SETTABLE 0 #4 #1\n SETTABLE 0 #5 #1\n"
+            + "SETTABLE 0 #6 #1\n SETTABLE 0 #7 #1\n SETTABLE 0 #8 #1\n SETTABLE 0 #9 #1\n JMP 0 >body\n end");
+        Due.is("room", exactly.finish(), "error 11");
+        Due.is("just 300,000 of room made", exactly.x.count(7), 300_000);
         Play closures = Play.of("main 4\n GLOBAL 0 'pcall'\n CLOSURE 1 f\n CALL 0 2 0\n RETURN 0 0\n function f 0 0 3 u0 u0 u0\nbody:\n CLOSURE 1 g\n JMP 0 >body\n function g 0 0 2 r0 r0 r0 r0 r0 r0 r0\n RETURN 0 1\n end\n end");
         Due.is("upvalues", closures.finish(), "error 11");
         Due.is("upvalues made", closures.x.count(7), 300_000);

@@ -159,6 +159,8 @@ public final class InstructionsTest {
         Play.due("main 6\n CLOSURE 0 f\n CALL 0 1 5\n RETURN 0 5\n" + f, "nil nil nil nil");
         Play.due("main 6\n CLOSURE 0 f\n LOADK 1 #1\n LOADK 2 #2\n LOADK 3 #3\n LOADK 4 #4\n CALL 0 5 1\n CLOSURE 0 f\n LOADK 1 #1\n LOADK 2 #2\n CALL 0 3 5\n RETURN 0 5\n" + f, "1 2 nil nil");
         Play.due("main 6\n VARARG 0 0\n RETURN 0 0", "");
+        Play.due("main 6\n LOADK 0 #1\n LOADK 1 #2\n LOADK 2 #3\n VARARG 1 2\n RETURN 0 4", "1 nil 3");
+        Play.due("main 6\n LOADK 0 #1\n VARARG 0 1\n RETURN 0 2", "1");
         Play.due("main 6\n CLOSURE 0 f\n LOADK 1 #1\n LOADK 2 #2\n CALL 0 3 0\n RETURN 0 0\n function f 0 0 4\n VARARG 0 0\n RETURN 0 0\n end", "");
         Play.due("main 6\n CLOSURE 0 f\n LOADK 1 #1\n LOADK 2 #2\n LOADK 3 #3\n CALL 0 4 0\n RETURN 0 0\n function f 1 1 4\n LOADK 1 #9\n VARARG 2 0\n RETURN 0 0\n end", "1 9 2 3");
         Play.due("main 6\n CLOSURE 0 f\n LOADK 1 #1\n LOADK 2 #2\n CALL 0 3 2\n LEN 1 0\n GETTABLE 2 0 #5\n RETURN 1 3\n"

@@ -57,6 +57,8 @@ public final class MetamethodsTest {
         String no = "\n function f 2 0 3\n RETURN 0 1\n end";
         Play.due(with(yes, "NEWTABLE 6\n EQ 0 6 0\n JMP 0 1\n RETURN 0 1\n LT 0 0 'a'\n JMP 0 1\n RETURN 0 1\n LOADK 5 #1\n RETURN 5 2" + no), "1");
         Play.due(with(yes, "EQ 1 0 0\n JMP 0 1\n RETURN 0 1\n EQ 0 0 #1\n JMP 0 1\n RETURN 0 1\n LOADK 5 #1\n RETURN 5 2" + no), "1");
+        String falsely = "\n function f 2 0 3\n LOADBOOL 0 0 0\n RETURN 0 2\n end";
+        Play.due(with(yes, "NEWTABLE 6\n EQ 0 6 0\n JMP 0 1\n RETURN 0 1\n LT 0 0 'a'\n JMP 0 1\n RETURN 0 1\n LE 0 0 0\n JMP 0 1\n RETURN 0 1\n LOADK 5 #1\n RETURN 5 2" + falsely), "1");
         Play.due(with("CLOSURE 5 f\n SETTABLE 1 '__lt' 5", "LE 1 0 0\n JMP 0 0\n RETURN 0 1" + f), "error 3");
     }
 

@@ -4,6 +4,7 @@ public final class TablesTest {
         readsAndWrites();
         growsWhenItIsFull();
         dropsDeadOnes();
+        findsWhatIsThere();
         keepsItsOrder();
         measuresTheLeastBorder();
         writesLists();
@@ -48,6 +49,19 @@ public final class TablesTest {
         Due.is("with more than half taken the room is doubled", one.x.count(6), 40);
         Play.due(four + "SETTABLE 0 'b' nil\n GLOBAL 1 'next'\n MOVE 2 0\n LOADK 3 'b'\n CALL 1 3 3\n RETURN 1 3", "'c' 3");
         Play.due(four + "SETTABLE 0 'b' nil\n SETTABLE 0 'b' #7\n GLOBAL 1 'next'\n MOVE 2 0\n LOADK 3 'a'\n CALL 1 3 3\n RETURN 1 3", "'b' 7");
+    }
+
+    /** Keys come and go, in whole numbers and strings; what is gone is not found, what is there is. */
+    private static void findsWhatIsThere() {
+        Play play = Play.of("main 14\n NEWTABLE 0\n LOADK 1 #1\n LOADK 2 #2000\n LOADK 3 #1\n LOADK 9 #0\n FORPREP 1 >next\nbody:\n LOADK 6 'k'\n MOVE 7 4\n CONCAT 5 6 7\n SETTABLE 0 4 4\n SETTABLE 0 5 4\n"
+            + "SUB 8 4 #7\n GETTABLE 10 0 8\n EQ 1 10 8\n JMP 0 >old\n LT 1 8 #1\n JMP 0 >old\n LOADK 9 #-1000000\nold:\n SETTABLE 0 8 nil\n LOADK 6 'k'\n MOVE 7 8\n CONCAT 5 6 7\n SETTABLE 0 5 nil\n"
+            + "SUB 8 4 #8\n GETTABLE 10 0 8\n EQ 1 10 nil\n JMP 0 >gone\n LOADK 9 #-1000000\ngone:\n ADD 9 9 #1\nnext:\n FORLOOP 1 >body\n MOVE 8 9\n"
+            + "GLOBAL 1 'next'\n MOVE 2 0\n LOADNIL 3 0\n LOADK 9 #0\n JMP 0 >in\nmore:\n ADD 9 9 #1\nin:\n TFORCALL 1 1\n TFORLOOP 3 >more\n RETURN 8 3");
+        Due.is("turns that found all, and entries that are left", play.finish(), "2000 14");
+        Due.is("room", play.x.count(6), 32 + 32);
+        Play again = Play.of("main 14\n NEWTABLE 0\n LOADK 1 #1\n LOADK 2 #500\n LOADK 3 #1\n FORPREP 1 >next\nbody:\n MOD 5 4 #13\n SETTABLE 0 5 4\n SUB 5 4 #5\n MOD 5 5 #13\n SETTABLE 0 5 nil\nnext:\n FORLOOP 1 >body\n"
+            + "GLOBAL 1 'next'\n MOVE 2 0\n LOADNIL 3 0\n LOADK 8 #0\n LOADK 9 ''\n JMP 0 >in\nmore:\n MOVE 10 4\n CONCAT 9 9 10\n ADD 8 8 5\nin:\n TFORCALL 1 2\n TFORLOOP 3 >more\n RETURN 8 3");
+        Due.is("the sum of 496 to 500, and their keys in the order of their entries", again.finish(), "2490 '45623'");
     }
 
     private static void keepsItsOrder() {
