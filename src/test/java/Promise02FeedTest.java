@@ -8,6 +8,7 @@ public final class Promise02FeedTest {
     }
 
     private static void givesTheLength() {
+        Due.by("come to THE TAPE: its length");
         LuaMachine x = new LuaMachine();
         Due.is("first feed", x.feed(0, 0, 0, 0, 0), 20);
         Due.is("second feed", x.feed(-1, -1, -1, -1, -1), 40);
@@ -17,6 +18,7 @@ public final class Promise02FeedTest {
     }
 
     private static void putsTheHighestByteFirst() {
+        Due.by("The four bytes of each, the highest first");
         LuaMachine x = new LuaMachine();
         // main of 2 registers with the one constant "A\u00c2" and the code LOADK 0 0, RETURN 0 2
         x.feed(0x00010201, 0x01000001, 0x04000241, 0xC2000200, 0x00000101);
@@ -29,7 +31,9 @@ public final class Promise02FeedTest {
         Due.is("second byte", x.byteOf(0, 1), 0xC2);
     }
 
+    /** More calls than an object promises to answer, but the tape's end is not nearer. */
     private static void refusesWhatHasNoRoom() {
+        Due.by("IllegalStateException: there is no room for 20.");
         LuaMachine x = new LuaMachine();
         for (int i = 0; i < 3276; i++) {
             x.feed(i, i, i, i, i);

@@ -1,6 +1,13 @@
 /** Promise 3: end. */
 public final class Promise03EndTest {
     public static void main(String[] args) {
+        takesWhatIsThere();
+        keepsTheFirstBytes();
+        Due.end();
+    }
+
+    private static void takesWhatIsThere() {
+        Due.by("IllegalArgumentException: not 0 .. its length.");
         LuaMachine x = new LuaMachine();
         Due.is("end(0) of an empty tape", x.end(0), 0);
         Due.isThrown("end(1) of an empty tape", () -> x.end(1), IllegalArgumentException.class);
@@ -14,11 +21,12 @@ public final class Promise03EndTest {
         Due.isThrown("end behind what has stayed", () -> x.end(8), IllegalArgumentException.class);
         Due.is("end(0)", x.end(0), 0);
         Due.is("count(0) at last", x.count(0), 0);
-        keepsTheFirstBytes();
-        Due.end();
+        Due.isThrown("end(1) behind it", () -> x.end(1), IllegalArgumentException.class);
+        Due.isThrown("end far behind it", () -> x.end(Integer.MAX_VALUE), IllegalArgumentException.class);
     }
 
     private static void keepsTheFirstBytes() {
+        Due.by("Only the first n bytes of THE TAPE stay: n.");
         Play play = new Play();
         byte[] chunk = Assembler.chunk("main 2\n LOADK 0 #5\n RETURN 0 2");
         play.put(chunk);

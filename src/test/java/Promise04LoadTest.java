@@ -13,6 +13,8 @@ public final class Promise04LoadTest {
     }
 
     private static void tellsHowManyPrototypes() {
+        Due.by("its outermost PROTOTYPE's closure is called by the main coroutine, without arguments (its FRAME is there): how many PROTOTYPES");
+        Play.due("main 3\n GLOBAL 0 'select'\n LOADK 1 '#'\n VARARG 2 0\n CALL 0 0 2\n RETURN 0 2", "0");
         Play play = new Play();
         play.put(Assembler.chunk(THREE));
         Due.is("load", play.x.load(), 3);
@@ -23,6 +25,7 @@ public final class Promise04LoadTest {
 
     /** Globals 0, 56 names, the variable, the constants' strings, the closure, the main coroutine. */
     private static void makesWhatItMakesInOrder() {
+        Due.by("LOAD makes, in this order");
         Due.is("numbers without strings of its own", Play.answer("main 4\n GETUPVAL 0 0\n GLOBAL 1 'running'\n CALL 1 1 2\n NEWTABLE 2\n RETURN 0 4"),
             "table:0 coroutine:59 table:60");
         Due.is("numbers with two strings of its own, one of them twice, one built in",
@@ -34,6 +37,7 @@ public final class Promise04LoadTest {
     }
 
     private static void beginsAnew() {
+        Due.by("all is as at first (but LIMIT; counts of what was made and collected, too, begin anew)");
         Play play = Play.of("main 4\n NEWTABLE 0\n SETGLOBAL 'x' 0\n GLOBAL 0 'print'\n LOADK 1 #1\n CALL 0 2 1\n LOADK 0 #9\n RETURN 0 2");
         play.x.limit(300);
         play.finish();
@@ -47,15 +51,26 @@ public final class Promise04LoadTest {
     }
 
     private static void takesTheTapeAlsoWhenItThrows() {
+        Due.by("UnsupportedOperationException: a FAULT (there is no CHUNK then).");
         Play play = Play.of(THREE);
         play.x.feed(0, 0, 0, 0, 0);
         Due.isThrown("load", () -> play.x.load(), UnsupportedOperationException.class);
         Due.is("counts behind it", play.counts(0, 11), "0 0 0 0 0 0 0 0 0 0 0 0");
         Due.isThrown("run behind it", () -> play.x.run(1), IllegalStateException.class);
         Due.isThrown("collect behind it", () -> play.x.collect(), IllegalStateException.class);
+        play.put(Assembler.chunk("main 4\n GLOBAL 0 'print'\n LOADK 1 #1\n CALL 0 2 1\n LOADK 0 #9\n RETURN 0 2"));
+        play.x.load();
+        Due.is("a program that ends", play.finish() + " " + play.printed(), "9 1\n");
+        play.x.feed(0, 0, 0, 0, 0);
+        Due.isThrown("load", () -> play.x.load(), UnsupportedOperationException.class);
+        Due.isThrown("its results", () -> play.x.kind(0), IndexOutOfBoundsException.class);
+        Due.isThrown("its results' values", () -> play.x.value(0), IndexOutOfBoundsException.class);
+        Due.isThrown("its output", () -> play.x.output(0), IndexOutOfBoundsException.class);
+        Due.is("counts behind it", play.counts(0, 11), "0 0 0 0 0 0 0 0 0 0 0 0");
     }
 
     private static void refusesMoreObjectsThanTheLimit() {
+        Due.by("IllegalStateException: it needs more than LIMIT OBJECTS (nothing is collected in load), or what may be made in all, before the first STEP (there is no CHUNK then, and no FAULT)");
         Play play = new Play();
         play.x.limit(200);
         play.put(withStrings(140));
@@ -86,6 +101,7 @@ public final class Promise04LoadTest {
 
     /** A string that doubles makes 400,000 bytes nearly full; the names of one load more are too much, another load's time. */
     private static void refusesMoreThanMayBeMadeInAll() {
+        Due.by("or what may be made in all, before the first STEP");
         Play play = Play.of("main 6\n LOADK 0 'ab'\n LOADK 1 #1\n LOADK 2 #15\n LOADK 3 #1\n FORPREP 1 >next\nbody:\n MOVE 5 0\n MOVE 4 0\n CONCAT 0 4 5\n"
             + "next:\n FORLOOP 1 >body\n LEN 0 0\n RETURN 0 2");
         Due.is("length", play.finish(), "65536");

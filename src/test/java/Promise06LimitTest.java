@@ -1,16 +1,24 @@
 /** Promise 6: limit. */
 public final class Promise06LimitTest {
     public static void main(String[] args) {
+        takes200To4000();
+        boundsWhatExists();
+        isLookedAtFromNowOn();
+        Due.end();
+    }
+
+    private static void takes200To4000() {
+        Due.by("LIMIT is n from now on, 200 .. 4,000: what it was. IllegalArgumentException: another n.");
         LuaMachine x = new LuaMachine();
         Due.is("limit(200)", x.limit(200), 1000);
         Due.is("limit(4000)", x.limit(4000), 200);
         Due.isThrown("limit(199)", () -> x.limit(199), IllegalArgumentException.class);
         Due.isThrown("limit(4001)", () -> x.limit(4001), IllegalArgumentException.class);
         Due.isThrown("limit(-1)", () -> x.limit(-1), IllegalArgumentException.class);
+        Due.isThrown("limit(0)", () -> x.limit(0), IllegalArgumentException.class);
+        Due.isThrown("the least limit", () -> x.limit(Integer.MIN_VALUE), IllegalArgumentException.class);
+        Due.isThrown("the most limit", () -> x.limit(Integer.MAX_VALUE), IllegalArgumentException.class);
         Due.is("limit(1000)", x.limit(1000), 4000);
-        boundsWhatExists();
-        isLookedAtFromNowOn();
-        Due.end();
     }
 
     /** A list of tables, each holding the one before. */
@@ -27,6 +35,7 @@ public final class Promise06LimitTest {
     }
 
     private static void isLookedAtFromNowOn() {
+        Due.by("LIMIT is n from now on");
         Play play = Play.of(CHAIN);
         play.x.limit(4000);
         play.x.run(4 * 500);

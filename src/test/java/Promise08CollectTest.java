@@ -1,8 +1,10 @@
 /** Promise 8: collect; CollectionTest has what is reached. */
 public final class Promise08CollectTest {
     public static void main(String[] args) {
+        Due.by("IllegalStateException: there is no CHUNK.");
         LuaMachine none = new LuaMachine();
         Due.isThrown("collect without a chunk", () -> none.collect(), IllegalStateException.class);
+        Due.by("COLLECTION, between two STEPS: EXISTING.");
         Play play = Play.of("main 3\n NEWTABLE 0\n NEWTABLE 1\n SETTABLE 0 #1 1\n LOADNIL 1 0\n LOADNIL 0 0\n RETURN 0 1");
         Due.is("collect before the first step", play.x.collect(), 60);
         play.x.run(3);

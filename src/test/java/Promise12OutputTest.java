@@ -8,6 +8,7 @@ public final class Promise12OutputTest {
     }
 
     private static void printsEachKind() {
+        Due.by("Byte i of the OUTPUT");
         Play play = Play.of("main 12\n GLOBAL 0 'print'\n LOADNIL 1 0\n LOADBOOL 2 0 0\n LOADBOOL 3 1 0\n LOADK 4 #-12\n LOADK 5 'x\u00fe'\n GETUPVAL 6 0\n"
             + "GLOBAL 7 'type'\n CLOSURE 8 f\n GLOBAL 9 'running'\n CALL 9 1 2\n CALL 0 10 1\n GLOBAL 0 'print'\n CALL 0 1 1\n GLOBAL 0 'print'\n"
             + "LOADK 1 #-9223372036854775808\n LOADK 2 #0\n CALL 0 3 2\n RETURN 0 2\n function f 0 0 2\n RETURN 0 1\n end");
@@ -24,6 +25,7 @@ public final class Promise12OutputTest {
     }
 
     private static void asksForNoMetamethodAndMakesNothing() {
+        Due.by("(but nothing is made, no metamethod asked for)");
         Play play = Play.of("main 5\n NEWTABLE 0\n GLOBAL 1 'type'\n SETTABLE 0 '__tostring' 1\n GLOBAL 1 'setmetatable'\n MOVE 2 0\n MOVE 3 0\n CALL 1 3 1\n"
             + "GLOBAL 1 'print'\n MOVE 2 0\n LOADK 3 #77\n CALL 1 3 1\n RETURN 0 1");
         play.finish();
@@ -33,6 +35,7 @@ public final class Promise12OutputTest {
 
     /** 66 times 303 bytes and 2 more fit. */
     private static void keepsTheFirstBytes() {
+        Due.by("(of which more than 20,000 are not kept)");
         StringBuilder name = new StringBuilder();
         for (int i = 0; i < 302; i++) {
             name.append((char) ('a' + i % 26));
@@ -43,5 +46,6 @@ public final class Promise12OutputTest {
         Due.is("bytes that are kept", play.x.count(1), 20_000);
         Due.is("the last one", play.x.output(19_999), 'b');
         Due.isThrown("one more", () -> play.x.output(20_000), IndexOutOfBoundsException.class);
+        Due.isThrown("the last there could be", () -> play.x.output(Integer.MAX_VALUE), IndexOutOfBoundsException.class);
     }
 }

@@ -10,6 +10,10 @@ public final class Promise13CountTest {
     }
 
     private static void answersAnyNumber() {
+        Due.by("Else -1. Without a CHUNK 1 to 11 are 0.");
+        Play none = new Play();
+        none.x.feed(0, 0, 0, 0, 0);
+        Due.is("all without a chunk", none.counts(-1, 12), "-1 20 0 0 0 0 0 0 0 0 0 0 0 -1");
         Play play = Play.of("main 2\n RETURN 0 1");
         for (int what : new int[] {-1, 12, 13, Integer.MIN_VALUE, Integer.MAX_VALUE}) {
             Due.is("count(" + what + ")", play.x.count(what), -1);
@@ -18,6 +22,7 @@ public final class Promise13CountTest {
     }
 
     private static void countsWhatIsMade() {
+        Due.by("2 STEPS since load; 3 EXISTING; 4 OBJECTS made; 5 COLLECTIONS (collect's too); 6 ROOMS; 7 ROOM made in all; 8 bytes of strings made");
         Play play = Play.of("main 6\n NEWTABLE 0\n SETTABLE 0 #1 #1\n SETTABLE 0 #2 #1\n SETTABLE 0 #3 #1\n SETTABLE 0 #4 #1\n SETTABLE 0 #5 #1\n"
             + "LOADK 1 #12\n LOADK 2 #345\n CONCAT 1 1 2\n CLOSURE 2 f\n CLOSURE 2 f\n RETURN 0 1\n"
             + "function f 0 0 2 r0 r1 u0\n RETURN 0 1\n end");
@@ -43,6 +48,7 @@ public final class Promise13CountTest {
     }
 
     private static void countsFrames() {
+        Due.by("9 FRAMES of the running coroutine (0 when the main one has ended)");
         Play play = Play.of("main 4\n GLOBAL 0 'pcall'\n CLOSURE 1 f\n CALL 0 2 1\n RETURN 0 1\n"
             + "function f 0 0 4 u0\n GLOBAL 0 'resume'\n GLOBAL 1 'create'\n CLOSURE 2 g\n CALL 1 2 2\n CALL 0 2 1\n RETURN 0 1\n"
             + "function g 0 0 2\n LOADNIL 0 0\n RETURN 0 1\n end\n end");
@@ -56,6 +62,7 @@ public final class Promise13CountTest {
     }
 
     private static void countsCoroutines() {
+        Due.by("11 coroutines that exist");
         Play play = Play.of("main 3\n GLOBAL 0 'create'\n GLOBAL 1 'print'\n CALL 0 2 1\n GLOBAL 0 'wrap'\n GLOBAL 1 'print'\n CALL 0 2 1\n RETURN 0 1");
         play.x.run(3);
         Due.is("coroutines", play.x.count(11), 2);
@@ -68,6 +75,7 @@ public final class Promise13CountTest {
     }
 
     private static void countsResults() {
+        Due.by("10 results, 1 for an ERROR, 0 before");
         Play play = Play.of("main 250\n RETURN 0 251");
         Due.is("before", play.x.count(10), 0);
         play.x.run(1);

@@ -5,8 +5,14 @@ final class Due {
     }
 
     private static int wrong;
+    private static String sentence = "";
 
     private Due() {
+    }
+
+    /** The words of the document that the answers from here on are due by. */
+    static void by(String words) {
+        sentence = words;
     }
 
     static void is(String what, long got, long want) {
@@ -16,7 +22,7 @@ final class Due {
     static void is(String what, String got, String want) {
         if (!got.equals(want)) {
             wrong++;
-            System.out.println(what + " answered " + got + ", due is " + want);
+            System.out.println(what + " answered " + got + ", due is " + want + (sentence.isEmpty() ? "" : ", by \"" + sentence + "\""));
         }
     }
 

@@ -19,6 +19,25 @@ final class Play {
         Due.is(program.replace('\n', ';'), answer(program), want);
     }
 
+    /** What load finds wrong with these bytes, and where. */
+    static String faultOf(byte[] bytes) {
+        Play play = new Play();
+        play.put(bytes);
+        try {
+            play.x.load();
+        } catch (UnsupportedOperationException e) {
+            return play.x.fault(0) + " at " + play.x.fault(1);
+        }
+        return "none";
+    }
+
+    /** The bytes with one of them changed. */
+    static byte[] with(byte[] bytes, int at, int value) {
+        byte[] changed = bytes.clone();
+        changed[at] = (byte) value;
+        return changed;
+    }
+
     void put(byte[] bytes) {
         int start = x.count(0);
         for (int i = 0; i < bytes.length; i += 20) {
