@@ -295,6 +295,7 @@ public final class BoundaryBuiltInsTest {
         called("char #65 #66 #67", "'ABC'");
         called("char #65 #256", "error 7");
         called("char", "''");
+        Play.due("main 4\n GLOBAL 0 'tostring'\n LOADK 1 #12\n CALL 0 2 2\n GLOBAL 1 'char'\n LOADK 2 #65\n CALL 1 2 2\n RETURN 0 3", "'12' 'A'");
     }
 
     private static void wantsStrings() {
@@ -312,6 +313,10 @@ public final class BoundaryBuiltInsTest {
             called("byte 'a' " + wrong, "error 3");
             called("char " + wrong, "error 3");
         }
+        // what is beyond their arguments says nothing
+        called("sub 'abc' #2 #3 'x'", "'bc'");
+        called("byte 'abc' #2 'x'", "98");
+        called("len 'abc' 'x'", "3");
         called("char nil", "error 3");
         called("char #65 nil", "error 3");
     }

@@ -133,6 +133,13 @@ public final class BoundaryCollectionTest {
         String call = "main 8\n CLOSURE 0 f\n CLOSURE 1 g\n CALL 1 1 0\n CALL 0 0 2\n RETURN 0 2";
         kept(call + String.format(f, 1), 2 + 2);
         kept(call + String.format(f, 0), 2);
+        Play none = Play.of("main 8\n CLOSURE 0 f\n NEWTABLE 1\n LOADNIL 1 0\n CLOSURE 1 g\n CALL 1 1 0\n CALL 0 0 1\n RETURN 0 1\n function f 0 0 2\n LOADNIL 0 0\n RETURN 0 1\n end\n function g 0 0 4\n NEWTABLE 0\n NEWTABLE 1\n RETURN 0 3\n end");
+        none.x.run(5 + 3 + 1);
+        Due.is("arguments that none takes", none.x.collect(), 62);
+        Play given = Play.of("main 8\n GLOBAL 0 'wrap'\n CLOSURE 1 f\n CALL 0 2 2\n MOVE 1 0\n CALL 1 1 1\n CLOSURE 1 g\n MOVE 2 0\n CALL 1 2 1\n RETURN 0 1\n"
+            + "function f 0 0 2 u0\n GLOBAL 0 'yield'\n CALL 0 1 1\n LOADNIL 0 0\n RETURN 0 1\n end\n function g 1 0 4\n NEWTABLE 1\n TAILCALL 0 2\n end");
+        given.x.run(5 + 2 + 3 + 2 + 1);
+        Due.is("what yield is given and does not take: f, its coroutine, wrap's, g", given.x.collect(), 64);
     }
 
     private static void reachesOpenRows() {
@@ -200,6 +207,8 @@ public final class BoundaryCollectionTest {
         kept(dead + COLLECT, 2);
         // until the room is full and they go
         kept(dead + "\n SETTABLE 0 #4 #1" + COLLECT, 1);
+        // and what stood behind the entries that are left is nothing
+        kept("main 8\n NEWTABLE 0\n NEWTABLE 1\n SETTABLE 0 'print' #1\n SETTABLE 0 'type' #2\n SETTABLE 0 'next' #3\n SETTABLE 0 'len' 1\n LOADNIL 1 0\n SETTABLE 0 'print' nil\n SETTABLE 0 'type' nil\n SETTABLE 0 'sub' #5\n SETTABLE 0 'len' nil" + COLLECT, 1);
     }
 
     private static void reachesMetatables() {

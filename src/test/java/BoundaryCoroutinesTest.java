@@ -16,6 +16,9 @@ public final class BoundaryCoroutinesTest {
         wrapsANewCoroutine();
         raisesWhatIsWrapped();
         existsAtMost32Times();
+        keepsEachApart();
+        sharesVariablesOfOnesThatHaveGone();
+        beginsWhereOneHasGone();
         Due.end();
     }
 
@@ -79,6 +82,10 @@ public final class BoundaryCoroutinesTest {
             + "GLOBAL 3 'resume'\n MOVE 4 0\n CALL 3 2 1\n" + String.format(status, 3, 4, 3) + "RETURN 1 4" + WAY, "'suspended' 'suspended' 'dead'");
         Play.due("main 8\n GLOBAL 0 'running'\n CALL 0 1 2\n SETGLOBAL 'm' 0\n GLOBAL 0 'wrap'\n CLOSURE 1 f\n CALL 0 2 2\n CALL 0 1 0\n RETURN 0 0\n"
             + "function f 0 0 6 u0\n GLOBAL 0 'status'\n GLOBAL 1 'm'\n CALL 0 2 2\n GLOBAL 1 'status'\n GLOBAL 2 'running'\n CALL 2 1 2\n CALL 1 2 2\n RETURN 0 3\n end", "'normal' 'running'");
+        // also when it has gone on a second time, and of the one that it has given way to
+        Play.due("main 8\n GLOBAL 0 'wrap'\n CLOSURE 1 f\n CALL 0 2 2\n MOVE 1 0\n CALL 1 1 1\n CALL 0 1 2\n GLOBAL 1 'status'\n GLOBAL 2 'running'\n CALL 2 1 2\n CALL 1 2 2\n RETURN 0 3\n"
+            + "function f 0 0 6 u0\n GLOBAL 0 'yield'\n CALL 0 1 1\n GLOBAL 0 'status'\n GLOBAL 1 'running'\n CALL 1 1 2\n TAILCALL 0 2\n end", "'running' 'running'");
+        Play.due("main 8\n GLOBAL 0 'resume'\n GLOBAL 1 'create'\n GLOBAL 2 'error'\n CALL 1 2 2\n CALL 0 2 1\n GLOBAL 0 'status'\n GLOBAL 1 'running'\n CALL 1 1 2\n CALL 0 2 2\n RETURN 0 2", "'running'");
     }
 
     private static void tellsWhoIsRunning() {
@@ -127,5 +134,31 @@ public final class BoundaryCoroutinesTest {
         Due.is("dead ones and loose ones go", loose.finish(), "");
         // 31 fit at first; each collection leaves the main one and that in R(5), which the call has overwritten
         Due.is("collections", loose.x.count(5), 2);
+    }
+
+    /** 31 beside the main one, all begun, each with a value of its own; before them as many that go. */
+    private static void keepsEachApart() {
+        Due.by("or 32 coroutines exist, for one of these");
+        String all = "LOADK 1 #1\n LOADK 2 #31\n LOADK 3 #1\n FORPREP 1 >next\nbody:\n GLOBAL 5 'wrap'\n CLOSURE 6 f\n CALL 5 2 2\n SETTABLE 0 4 5\n MOVE 6 4\n CALL 5 2 1\nnext:\n FORLOOP 1 >body\n";
+        String sum = "LOADK 7 #0\n LOADK 1 #1\n LOADK 2 #31\n LOADK 3 #1\n FORPREP 1 >last\nmore:\n GETTABLE 5 0 4\n CALL 5 1 2\n MUL 5 5 4\n ADD 7 7 5\nlast:\n FORLOOP 1 >more\n RETURN 7 2\n"
+            + "function f 1 0 3 u0\n GLOBAL 1 'yield'\n CALL 1 1 1\n RETURN 0 2\n end";
+        String squares = Integer.toString(31 * 32 * 63 / 6);
+        Play.due("main 10\n NEWTABLE 0\n " + all + sum, squares);
+        String twice = all.replace(">next", ">next2").replace("next:", "next2:").replace(">body", ">body2").replace("body:", "body2:");
+        Play.due("main 10\n NEWTABLE 0\n " + twice + "NEWTABLE 0\n LOADNIL 4 4\n GLOBAL 5 'collect'\n CALL 5 1 1\n " + all + sum, squares);
+    }
+
+    private static void sharesVariablesOfOnesThatHaveGone() {
+        Due.by("from closures their upvalues' variables, from these their values");
+        String f = "function f 0 0 4 u0\n LOADK 0 #5\n CLOSURE 1 get\n SETGLOBAL 'get' 1\n GLOBAL 1 'yield'\n CALL 1 1 1\n RETURN 0 1\n function get 0 0 2 r0\n GETUPVAL 0 0\n RETURN 0 2\n end\n end\n"
+            + "function g 0 0 4 u0\n LOADK 0 #99\n LOADK 1 #98\n GLOBAL 2 'yield'\n CALL 2 1 1\n RETURN 0 1\n end";
+        Play.due("main 6\n GLOBAL 0 'wrap'\n CLOSURE 1 f\n CALL 0 2 2\n CALL 0 1 1\n LOADNIL 0 1\n GLOBAL 2 'collect'\n CALL 2 1 1\n GLOBAL 0 'wrap'\n CLOSURE 1 g\n CALL 0 2 2\n CALL 0 1 1\n GLOBAL 1 'get'\n CALL 1 1 2\n RETURN 1 2\n" + f, "5");
+    }
+
+    /** One that has gone when it was deep leaves all registers to the next. */
+    private static void beginsWhereOneHasGone() {
+        Due.by("FRAMES of one coroutine");
+        String deep = "\n function deep 1 0 250 u0\n EQ 1 0 #0\n JMP 0 >last\n GLOBAL 1 'deep'\n SUB 2 0 #1\n CALL 1 2 2\n RETURN 1 2\nlast:\n GLOBAL 1 'yield'\n LOADK 2 #7\n CALL 1 2 1\n RETURN 0 2\n end";
+        Play.due("main 6\n CLOSURE 0 deep\n SETGLOBAL 'deep' 0\n GLOBAL 1 'wrap'\n MOVE 2 0\n CALL 1 2 2\n LOADK 2 #15\n CALL 1 2 2\n LOADNIL 1 1\n GLOBAL 1 'collect'\n CALL 1 1 1\n GLOBAL 1 'wrap'\n MOVE 2 0\n CALL 1 2 2\n LOADK 2 #15\n CALL 1 2 2\n RETURN 1 2" + deep, "7");
     }
 }

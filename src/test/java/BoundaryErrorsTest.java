@@ -92,6 +92,13 @@ public final class BoundaryErrorsTest {
         // 40 + 20 * 198 is 4,000, 41 + 20 * 198 is more
         Play.due(deep(40, 20, "GLOBAL 0 'f'\n CALL 0 1 1"), "false 4 198");
         Play.due(deep(41, 20, "GLOBAL 0 'f'\n CALL 0 1 1"), "false 4 197");
+        // those that wait have none: at 4,000 there is still room for them
+        String last = "main 250\n CLOSURE 0 deeper\n SETGLOBAL 'deeper' 0\n LOADK 1 #14\n CALL 0 2 0\n RETURN 0 0\n function deeper 1 0 250 u0\n EQ 1 0 #0\n JMP 0 >last\n GLOBAL 1 'deeper'\n SUB 2 0 #1\n CALL 1 2 0\n RETURN 1 0\nlast:\n %s\n CALL 1 2 0\n RETURN 1 0\n end";
+        Play.due(String.format(last, "GLOBAL 1 'pcall'\n GLOBAL 2 'type'"), "true 'nil'");
+        Play.due(String.format(last, "GLOBAL 1 'resume'\n GLOBAL 2 'create'\n GLOBAL 3 'type'\n CALL 2 2 2"), "true 'nil'");
+        Play.due(String.format(last, "GLOBAL 1 'wrap'\n GLOBAL 2 'type'\n CALL 1 2 2"), "'function'");
+        Play.due(String.format(last, "NEWTABLE 2\n GLOBAL 3 'type'\n SETTABLE 2 '__tostring' 3\n GLOBAL 3 'setmetatable'\n MOVE 4 2\n MOVE 5 2\n CALL 3 3 1\n GLOBAL 1 'tostring'"), "'table'");
+        Play.due(String.format(last, "GLOBAL 1 'deeper'\n LOADK 2 #0"), "error 4");
     }
 
     private static void countsFurtherArguments() {

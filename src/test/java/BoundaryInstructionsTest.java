@@ -9,6 +9,8 @@ public final class BoundaryInstructionsTest {
         joinsARow();
         jumpsFarAndBack();
         closesFromARegisterOn();
+        sharesWhateverIsWritten();
+        leavesRegistersWhenItWrites();
         testsAndSets();
         callsWithNoneOrMany();
         fillsMissingResults();
@@ -35,7 +37,7 @@ public final class BoundaryInstructionsTest {
     private static void loadsTruths() {
         Due.by("3 R(A) = (B is not 0); C not 0: skip.");
         Play.due("main 3\n LOADBOOL 0 0 0\n LOADBOOL 1 1 0\n LOADBOOL 2 511 0\n RETURN 0 4", "false true true");
-        for (int c : new int[] {0, 1, 2, 511}) {
+        for (int c : new int[] {0, 1, 2, 256, 511}) {
             Play.due("main 2\n LOADK 1 #7\n LOADBOOL 0 0 " + c + "\n LOADK 1 #8\n RETURN 1 2", c == 0 ? "8" : "7");
         }
     }
@@ -87,6 +89,36 @@ public final class BoundaryInstructionsTest {
         Play.due(String.format(program, 2), "10 2 3");
         Play.due(String.format(program, 3), "10 20 3");
         Play.due(String.format(program, 4), "10 20 30");
+        // in whatever order the variables were made
+        String[] orders = {"r0 r1 r2", "r0 r2 r1", "r1 r0 r2", "r1 r2 r0", "r2 r0 r1", "r2 r1 r0"};
+        for (String order : orders) {
+            String mixed = program.replace("r0 r1 r2", order);
+            String[] parts = order.replace("r", "").split(" ");
+            for (int from = 0; from <= 3; from++) {
+                StringBuilder want = new StringBuilder();
+                for (String part : parts) {
+                    int register = Integer.parseInt(part);
+                    want.append(want.length() > 0 ? " " : "").append(register >= from && from < 3 ? register + 1 : (register + 1) * 10);
+                }
+                Play.due(String.format(mixed, from == 3 ? 0 : from + 1), want.toString());
+            }
+        }
+    }
+
+    private static void sharesWhateverIsWritten() {
+        Due.by("9 U(B) = R(A).");
+        for (String value : new String[] {"nil", "false", "'a'", "#7"}) {
+            String want = value.replace("#", "");
+            Play.due("main 4\n LOADK 0 #1\n CLOSURE 1 f\n CALL 1 1 1\n RETURN 0 2\n function f 0 0 2 r0\n LOADK 0 " + value + "\n SETUPVAL 0 0\n RETURN 0 1\n end", want);
+            Play.due("main 4\n LOADK 0 #1\n CLOSURE 1 f\n JMP 1 0\n CALL 1 1 2\n RETURN 0 3\n function f 0 0 2 r0\n LOADK 0 " + value + "\n SETUPVAL 0 0\n GETUPVAL 1 0\n RETURN 1 2\n end", "1 " + want);
+        }
+    }
+
+    private static void leavesRegistersWhenItWrites() {
+        Due.by("8 U(A)[RK(B)] = RK(C).");
+        String asked = "main 8\n GETUPVAL 1 0\n NEWTABLE 2\n CLOSURE 3 f\n SETTABLE 2 '__newindex' 3\n GLOBAL 3 'setmetatable'\n MOVE 4 1\n MOVE 5 2\n CALL 3 3 1\n LOADK 0 'old'\n %s\n RETURN 0 3\n function f 0 0 2\n LOADK 0 'new'\n RETURN 0 2\n end";
+        Play.due(String.format(asked, "SETGLOBAL 'y' #1"), "'old' table:0");
+        Play.due(String.format(asked, "SETTABLE 1 'y' #1"), "'old' table:0");
     }
 
     private static void testsAndSets() {
@@ -205,6 +237,9 @@ public final class BoundaryInstructionsTest {
                 }
             }
             Play.due("main 5\n LOADK 0 #1\n LOADK 1 #2\n LOADK 2 #1\n LOADK 3 'a'\n " + operation + " 0 0\n RETURN 0 1", "");
+            // what is no integer stays
+            Play.due("main 5\n GLOBAL 0 'pcall'\n CLOSURE 1 f\n CALL 0 2 3\n GLOBAL 2 'get'\n CALL 2 1 2\n RETURN 0 4\n function f 0 0 6 u0\n LOADK 0 'x'\n LOADK 1 #2\n LOADK 2 #1\n CLOSURE 4 get\n SETGLOBAL 'get' 4\n "
+                + operation + " 0 0\n RETURN 0 1\n function get 0 0 2 r0\n GETUPVAL 0 0\n RETURN 0 2\n end\n end", "false 3 'x'");
         }
     }
 
@@ -241,6 +276,8 @@ public final class BoundaryInstructionsTest {
         Play.due(String.format(list, "CLOSURE 1 none\n CALL 1 1 0"), "0");
         Play.due(String.format(list, "CLOSURE 1 two\n CALL 1 1 0"), "2");
         Play.due(String.format(list, "LOADK 1 #1\n LOADK 2 #1\n CLOSURE 3 two\n CALL 3 1 0"), "4");
+        // what an open row was before is not written
+        Play.due("main 6\n NEWTABLE 0\n CLOSURE 1 two\n CALL 1 1 0\n SETLIST 0 0 1\n NEWTABLE 0\n LOADK 1 #5\n SETLIST 0 1 1\n LEN 2 0\n NEWTABLE 0\n CLOSURE 1 none\n CALL 1 1 0\n SETLIST 0 0 1\n LEN 3 0\n RETURN 2 3" + TWO, "1 0");
         Play.due("main 6\n NEWTABLE 0\n NEWTABLE 1\n GLOBAL 2 'error'\n SETTABLE 1 '__newindex' 2\n GLOBAL 2 'setmetatable'\n MOVE 3 0\n MOVE 4 1\n CALL 2 3 1\n LOADK 1 #8\n SETLIST 0 1 1\n GETTABLE 1 0 #1\n RETURN 1 2", "8");
     }
 
@@ -259,6 +296,8 @@ public final class BoundaryInstructionsTest {
         Play.due("main 5\n CLOSURE 1 f\n CLOSURE 2 f\n RETURN 1 3" + f, "function:61 function:62");
         Play.due("main 5\n CLOSURE 1 f\n JMP 1 0\n CLOSURE 2 f\n RETURN 1 3" + f, "function:61 function:63");
         Play.due("main 5\n CLOSURE 1 f\n JMP 2 0\n CLOSURE 2 f\n RETURN 1 3" + f, "function:61 function:62");
+        // each upvalue of the one around, and of the one around that
+        Play.due("main 5\n LOADK 0 #1\n LOADK 1 #2\n LOADK 2 #3\n CLOSURE 3 f\n CALL 3 1 0\n RETURN 3 0\n function f 0 0 3 r0 r1 r2\n CLOSURE 0 g\n TAILCALL 0 1\n function g 0 0 4 u2 u1 u0 u1\n GETUPVAL 0 0\n GETUPVAL 1 1\n GETUPVAL 2 2\n GETUPVAL 3 3\n RETURN 0 5\n end\n end", "3 2 1 2");
     }
 
     private static void takesFurtherArguments() {
@@ -285,5 +324,6 @@ public final class BoundaryInstructionsTest {
         Play.due(String.format(call, 3), "8 9 nil nil");
         Play.due(String.format(call, 4), "8 9 nil nil");
         Play.due("main 250\n RETURN 248 3", "nil nil");
+        Play.due("main 6\n CLOSURE 0 dirty\n CALL 0 1 1\n CLOSURE 0 g\n CALL 0 1 2\n RETURN 0 2\n function g 2 0 4\n EQ 1 1 nil\n JMP 0 2\n LOADK 0 'not the same'\n RETURN 0 2\n EQ 1 3 nil\n JMP 0 1\n LOADK 0 'not the same'\n RETURN 0 2\n end" + f, "nil");
     }
 }

@@ -110,6 +110,8 @@ public final class BoundaryObjectsTest {
         Due.is("a coroutine and wrap's function", full("GLOBAL 6 'wrap'\n GLOBAL 7 'print'\n CALL 6 2 2\n RETURN 6 2", 1).finish(), "error 10");
         Due.is("both", full("GLOBAL 6 'wrap'\n GLOBAL 7 'print'\n CALL 6 2 2\n RETURN 6 2", 2).finish(), "function:199");
         Due.is("a string", full("LOADK 6 #1\n LOADK 7 #2\n CONCAT 6 6 7\n RETURN 6 2", 0).finish(), "error 10");
+        Due.is("a string while another waits", full("LOADK 6 #1\n LOADK 7 #2\n LOADK 8 #3\n CONCAT 6 6 8\n RETURN 6 2", 1).finish(), "error 10");
+        Due.is("both", full("LOADK 6 #1\n LOADK 7 #2\n LOADK 8 #3\n CONCAT 6 6 8\n RETURN 6 2", 2).finish(), "'123'");
         Due.is("a string that there is", full("LOADK 6 'pri'\n LOADK 7 'nt'\n CONCAT 6 6 7\n RETURN 6 2", 2).finish(), "'print'");
         Due.is("a text", full("GLOBAL 6 'tostring'\n LOADK 7 #77\n CALL 6 2 2\n RETURN 6 2", 0).finish(), "error 10");
         Due.is("the last text", full("GLOBAL 6 'tostring'\n LOADK 7 #77\n CALL 6 2 2\n RETURN 6 2", 1).finish(), "'77'");
@@ -209,6 +211,10 @@ public final class BoundaryObjectsTest {
         Play over = Play.of(String.format(program, k + 1));
         Due.is("two more", over.finish(), "error 11");
         Due.is("the last string is not made", over.x.count(8), 335 + 262_143 + k + 1);
+        // a constant of one byte more
+        Play one = Play.of(String.format(program, k).replace("RETURN 0 2", "RETURN 0 2\n LOADK 0 'b'\n RETURN 0 2"));
+        Due.is("one more", one.finish(), "error 11");
+        Due.is("the last string is not made", one.x.count(8), 335 + 1 + 262_143 + k);
     }
 
     private static void countsBytesOfNewStringsAlone() {

@@ -116,6 +116,12 @@ public final class BoundaryTablesTest {
         Play.due(three + "SETTABLE 0 #5 #1" + length, "3 3");
         Play.due(three + "SETTABLE 0 #5 #1\n SETTABLE 0 #4 #1" + length, "5 5");
         Play.due(three + "SETTABLE 0 #2 nil\n LEN 4 0\n SETTABLE 0 #2 #7" + length, "3 3");
+        Play.due(three + "SETTABLE 0 #5 #1\n SETTABLE 0 #5 nil" + length, "3 3");
+        Play.due(three + "SETTABLE 0 #0 #1\n SETTABLE 0 #0 nil" + length, "3 3");
+        Play.due(three + "SETTABLE 0 #-5 #1\n SETTABLE 0 #-5 nil" + length, "3 3");
+        Play.due(three + "SETTABLE 0 'x' #1\n SETTABLE 0 'x' nil" + length, "3 3");
+        // another table where one of some length has gone
+        Play.due(three + "LOADNIL 0 0\n GLOBAL 5 'collect'\n CALL 5 1 1\n NEWTABLE 0" + length, "0 0");
     }
 
     private static void findsTheNext() {

@@ -20,6 +20,8 @@ public final class BoundaryValuesTest {
         joinsStringsAndIntegers();
         joinsFromTheRight();
         tellsTheSame();
+        tellsTheSameWhereverItIsFrom();
+        tellsStringsApart();
         Due.end();
     }
 
@@ -67,7 +69,7 @@ public final class BoundaryValuesTest {
 
     private static void ordersStrings() {
         Due.by("Order of strings: byte by byte (0 .. 255), a beginning first.");
-        String[] inOrder = {"''", "'\0'", "'\0\0'", "'a'", "'aa'", "'ab'", "'b'", "'\u007f'", "'\u0080'", "'\u00ff'", "'\u00ff\0'"};
+        String[] inOrder = {"''", "'\0'", "'\0\0'", "'\u0001'", "'a'", "'aa'", "'ab'", "'b'", "'c'", "'\u007e'", "'\u007f'", "'\u0080'", "'\u0081'", "'\u00fe'", "'\u00ff'", "'\u00ff\0'"};
         for (int i = 0; i < inOrder.length; i++) {
             for (int k = 0; k < inOrder.length; k++) {
                 compared("LT", inOrder[i], inOrder[k], i < k);
@@ -250,5 +252,55 @@ public final class BoundaryValuesTest {
         Play.due("main 4\n GLOBAL 0 'print'\n GLOBAL 1 'print'\n EQ 0 0 1\n JMP 0 1\n LOADBOOL 2 1 1\n LOADBOOL 2 0 0\n RETURN 2 2", "true");
         Play.due("main 4\n GLOBAL 0 'print'\n GLOBAL 1 'type'\n EQ 0 0 1\n JMP 0 1\n LOADBOOL 2 1 1\n LOADBOOL 2 0 0\n RETURN 2 2", "false");
         Play.due("main 4\n CLOSURE 0 f\n CLOSURE 1 f\n EQ 0 0 1\n JMP 0 1\n LOADBOOL 2 1 1\n LOADBOOL 2 0 0\n RETURN 2 2\n function f 0 0 2\n RETURN 0 1\n end", "false");
+    }
+
+    /** R(0) is to be the same as a constant, also as a key. */
+    private static void same(String lines, String constant) {
+        Play.due("main 8\n " + lines + "\n EQ 0 0 " + constant + "\n JMP 0 1\n LOADBOOL 1 1 1\n LOADBOOL 1 0 0\n NEWTABLE 2\n SETTABLE 2 " + (constant.equals("nil") ? "#1" : constant) + " #5\n GETTABLE 2 2 0\n RETURN 1 3\n"
+            + "function none 0 0 2\n RETURN 0 1\n end\n function fresh 0 0 2\n RETURN 1 2\n end\n function further 0 1 2\n VARARG 0 2\n RETURN 0 2\n end", constant.equals("nil") ? "true nil" : "true 5");
+    }
+
+    private static void tellsTheSameWhereverItIsFrom() {
+        Due.by("31: the same; or both tables, and the first that has __eq: called with both.");
+        String dirty = "GLOBAL 3 'type'\n LOADK 4 #7\n ";
+        String[] nils = {"LOADK 0 nil", "LOADNIL 0 0", "CLOSURE 0 none\n CALL 0 1 2", "CLOSURE 0 fresh\n CALL 0 1 2", "CLOSURE 0 further\n CALL 0 1 2", "NEWTABLE 0\n GETTABLE 0 0 'x'", "NEWTABLE 0\n SETTABLE 0 'x' #9\n SETTABLE 0 'x' nil\n GETTABLE 0 0 'x'",
+            "GLOBAL 0 'rawget'\n NEWTABLE 1\n CALL 0 2 2", "GLOBAL 0 'next'\n NEWTABLE 1\n CALL 0 2 2", "GLOBAL 0 'getmetatable'\n NEWTABLE 1\n CALL 0 2 2", "GLOBAL 0 'byte'\n LOADK 1 ''\n CALL 0 2 2", "GLOBAL 0 'print'\n CALL 0 1 2",
+            "GLOBAL 0 'pcall'\n GLOBAL 1 'error'\n CALL 0 2 3\n MOVE 0 1", "GLOBAL 0 'nothing'", "GLOBAL 0 'select'\n LOADK 1 #1\n CALL 0 2 2", "GLOBAL 0 'wrap'\n GLOBAL 1 'print'\n CALL 0 2 2\n CALL 0 1 2"};
+        for (String lines : nils) {
+            same(dirty + lines, "nil");
+        }
+        String[] trues = {"LOADK 0 true", "LOADBOOL 0 1 0", "LOADBOOL 0 511 0", "LOADNIL 0 0\n NOT 0 0", "GLOBAL 0 'pcall'\n GLOBAL 1 'type'\n CALL 0 2 2", "GLOBAL 0 'rawequal'\n CALL 0 1 2", "GLOBAL 0 'running'\n CALL 0 1 3\n MOVE 0 1",
+            "GLOBAL 0 'resume'\n GLOBAL 1 'create'\n GLOBAL 2 'type'\n CALL 1 2 2\n CALL 0 2 2"};
+        for (String lines : trues) {
+            same(dirty + lines, "true");
+        }
+        String[] falses = {"LOADK 0 false", "LOADBOOL 0 0 0", "LOADK 0 #0\n NOT 0 0", "GLOBAL 0 'pcall'\n CALL 0 1 2", "GLOBAL 0 'rawequal'\n LOADK 1 #1\n CALL 0 2 2", "GLOBAL 0 'resume'\n GLOBAL 1 'running'\n CALL 1 1 2\n CALL 0 2 2",
+            "GLOBAL 0 'wrap'\n GLOBAL 1 'running'\n CALL 0 2 2\n CALL 0 1 3\n MOVE 0 1", "GLOBAL 0 'resume'\n GLOBAL 1 'create'\n GLOBAL 2 'error'\n CALL 1 2 2\n CALL 0 2 2"};
+        for (String lines : falses) {
+            same(dirty + lines, "false");
+        }
+    }
+
+    /** Strings that a sum of bytes by powers of 31 would take for one another. */
+    private static void tellsStringsApart() {
+        Due.by("strings (rows of bytes)");
+        compared("EQ", "'Aa'", "'BB'", false);
+        compared("EQ", "'x'", "'\u00c3x'", false);
+        Play.due("main 8\n LOADK 0 'A'\n LOADK 1 'a'\n CONCAT 2 0 1\n LOADK 0 'B'\n LOADK 1 'B'\n CONCAT 3 0 1\n RETURN 2 3", "'Aa' 'BB'");
+        // of three that are alike one goes, and its place is taken by a table; all three are needed again
+        String[] alike = {"LOADK 0 'AaA'\n LOADK 1 'a'\n CONCAT %d 0 1\n", "LOADK 0 'AaB'\n LOADK 1 'B'\n CONCAT %d 0 1\n", "LOADK 0 'BBA'\n LOADK 1 'a'\n CONCAT %d 0 1\n"};
+        for (int gone = 0; gone < 3; gone++) {
+            StringBuilder text = new StringBuilder("main 10\n ");
+            for (int i = 0; i < 3; i++) {
+                text.append(String.format(alike[i], 2 + i));
+            }
+            text.append("LOADNIL ").append(2 + gone).append(" 0\n GLOBAL 5 'collect'\n CALL 5 1 1\n NEWTABLE 5\n ");
+            for (int i = 0; i < 3; i++) {
+                text.append(String.format(alike[i], 6 + i));
+            }
+            Play play = Play.of(text + "RETURN 6 4");
+            Due.is("those that are alike", play.finish(), "'AaAa' 'AaBB' 'BBAa'");
+            Due.is("one of them is made again", play.x.count(4), 65 + 3 + 1 + 1);
+        }
     }
 }

@@ -19,6 +19,7 @@ public final class BoundaryWellFormedTest {
         skipsToInstructions();
         isFollowedByAnInstruction();
         isFollowedByAJump();
+        ignoresWhatSaysNothing();
         joinsAtLeastTwo();
         closesFromRegisters();
         hasRowsOfRegisters();
@@ -178,6 +179,7 @@ public final class BoundaryWellFormedTest {
         Due.by("what is behind a skip, is an instruction");
         ends("LOADBOOL 0 0 1\n RETURN 0 1\n RETURN 0 1", true);
         ends("LOADBOOL 0 0 1\n RETURN 0 1", false);
+        ends("LOADBOOL 0 0 256\n RETURN 0 1", false);
         ends("LOADBOOL 0 0 511\n RETURN 0 1", false);
         ends("LOADBOOL 0 0 0\n RETURN 0 1", true);
         for (String lines : TESTS) {
@@ -208,8 +210,35 @@ public final class BoundaryWellFormedTest {
             isFaulty(lines + "\n MOVE 0 0", 0);
             isFaulty(lines + "\n RETURN 0 1", 0);
             isFaulty(lines + "\n FORPREP 0 0", 0);
+            isFaulty(lines + "\n EQ 0 0 0\n JMP 0 0", 0);
         }
         isRight("NOT 0 0\n MOVE 0 0");
+    }
+
+    /** An instruction of raw fields. */
+    private static String raw(int operation, int a, int b, int c) {
+        return "RAW " + (operation | a << 6 | (long) c << 14 | (long) b << 23);
+    }
+
+    private static void ignoresWhatSaysNothing() {
+        Due.by("all that it names is there");
+        int[][] named = {{0, 0, 0, 511}, {4, 0, 0, 511}, {5, 0, 0, 511}, {9, 0, 0, 511}, {11, 0, 511, 511}, {25, 0, 0, 511}, {26, 0, 0, 511}, {27, 0, 0, 511}, {28, 0, 0, 511}, {37, 0, 1, 511}, {38, 0, 1, 511},
+            {41, 0, 511, 1}, {45, 0, 1, 511}};
+        for (int[] one : named) {
+            isRight(raw(one[0], one[1], one[2], one[3]));
+        }
+        isRight(raw(34, 0, 511, 0) + "\n JMP 0 0");
+        for (int c : new int[] {0, 1, 256, 511}) {
+            isRight(raw(45, 1, 0, c) + "\n " + raw(37, 0, 0, c));
+            isRight(raw(45, 1, 0, c) + "\n " + raw(38, 0, 0, c));
+            isFaulty(raw(37, 0, 0, c), 0);
+            isFaulty(raw(38, 0, 0, c), 0);
+            isFaulty(raw(45, 1, 0, c) + "\n MOVE 0 0", 0);
+        }
+        isRight("VARARG 1 0\n SETLIST 0 0 511");
+        isFaulty("SETLIST 0 0 511", 0);
+        Due.is("in the highest registers", Play.faultOf(Assembler.chunk("main 250\n CALL 249 1 0\n CALL 248 0 0\n RETURN 200 0\n CALL 128 1 0\n RETURN 128 0")), "none");
+        Due.is("behind in the highest registers", Play.faultOf(Assembler.chunk("main 250\n CALL 249 1 0\n CALL 249 0 1\n RETURN 0 1")), "6 at 10");
     }
 
     private static void joinsAtLeastTwo() {

@@ -10,6 +10,7 @@ public final class TablesTest {
         writesLists();
         takesKeysOfEachKind();
         closesUpItsPool();
+        worksWhereThePoolBegins();
         Due.end();
     }
 
@@ -102,5 +103,35 @@ public final class TablesTest {
             + "SETTABLE 0 4 4\n GETTABLE 6 5 4\n ADD 7 6 #0\nnext:\n FORLOOP 1 >body\n LOADK 8 #0\n LOADK 1 #1\n LOADK 2 #6000\n LOADK 3 #1\n FORPREP 1 >last\nsum:\n GETTABLE 5 0 4\n ADD 8 8 5\nlast:\n FORLOOP 1 >sum\n LEN 9 0\n RETURN 8 3");
         Due.is("the sum of 1 to 6,000, and how many", play.finish(), "18003000 6000");
         Due.is("all room", play.x.count(7), 61 + 6000 * 12 + 16380);
+    }
+
+    /** R(0) has one entry, R(1) is a table; the globals grow and so many tables come that R(0) lies where the pool begins. */
+    private static void first(String key, String value, String body, String want) {
+        StringBuilder text = new StringBuilder("main 12\n NEWTABLE 0\n NEWTABLE 1\n");
+        text.append(value.equals("f") ? "CLOSURE 2 f\n" : "LOADK 2 " + value + "\n");
+        text.append("SETTABLE 0 ").append(key).append(" 2\n");
+        for (int i = 0; i < 9; i++) {
+            text.append("SETGLOBAL 'g").append(i).append("' #1\n");
+        }
+        text.append("LOADK 2 #1\n LOADK 3 #13000\n LOADK 4 #1\n FORPREP 2 >next\nbody:\n NEWTABLE 6\n SETTABLE 6 #1 #1\nnext:\n FORLOOP 2 >body\n");
+        Play.due(text + body + "\n function f 0 0 2\n LOADK 0 'f'\n RETURN 0 2\n end", want);
+    }
+
+    private static void worksWhereThePoolBegins() {
+        String set = "GLOBAL 3 'setmetatable'\n MOVE 4 1\n MOVE 5 0\n CALL 3 3 1\n ";
+        first("'x'", "#7", "GETTABLE 2 0 'x'\n RETURN 2 2", "7");
+        first("'x'", "#7", "SETTABLE 0 'x' #8\n GETTABLE 2 0 'x'\n GLOBAL 3 'next'\n MOVE 4 0\n LOADK 5 'x'\n CALL 3 3 2\n RETURN 2 3", "8 nil");
+        first("'x'", "#7", "GLOBAL 3 'rawget'\n MOVE 4 0\n LOADK 5 'x'\n CALL 3 3 2\n RETURN 3 2", "7");
+        first("'x'", "#7", "GLOBAL 3 'next'\n MOVE 4 0\n CALL 3 2 3\n RETURN 3 3", "'x' 7");
+        first("#1", "#7", "LEN 2 0\n RETURN 2 2", "1");
+        first("'__index'", "f", set + "GETTABLE 2 1 'x'\n RETURN 2 2", "'f'");
+        first("'__newindex'", "#1", set + "SETTABLE 1 'x' #1\n RETURN 2 2", "error 2");
+        first("'__call'", "f", set + "MOVE 2 1\n CALL 2 1 2\n RETURN 2 2", "'f'");
+        first("'__add'", "f", set + "ADD 2 1 #1\n RETURN 2 2", "'f'");
+        first("'__add'", "f", set + "ADD 2 #1 1\n RETURN 2 2", "'f'");
+        first("'__len'", "f", set + "LEN 2 1\n RETURN 2 2", "'f'");
+        first("'__tostring'", "f", set + "GLOBAL 2 'tostring'\n MOVE 3 1\n CALL 2 2 2\n RETURN 2 2", "'f'");
+        first("'__metatable'", "#7", set + "GLOBAL 2 'getmetatable'\n MOVE 3 1\n CALL 2 2 2\n RETURN 2 2", "7");
+        first("'__metatable'", "#7", set + "GLOBAL 3 'setmetatable'\n MOVE 4 1\n MOVE 5 0\n CALL 3 3 1\n RETURN 2 2", "error 8");
     }
 }
