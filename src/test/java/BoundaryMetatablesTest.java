@@ -46,6 +46,10 @@ public final class BoundaryMetatablesTest {
             Play.due("main 4\n GLOBAL 0 'setmetatable'\n LOADK 1 " + value + "\n NEWTABLE 2\n CALL 0 3 2\n RETURN 0 2", "error 2");
         }
         Play.due("main 4\n GLOBAL 0 'getmetatable'\n GETUPVAL 1 0\n CALL 0 2 2\n RETURN 0 2", "nil");
+        // the globals too can be one
+        String globals = "main 8\n NEWTABLE 0\n GETUPVAL 1 0\n SETGLOBAL '__index' 1\n GLOBAL 2 'setmetatable'\n MOVE 3 0\n MOVE 4 1\n CALL 2 3 1\n ";
+        Play.due(globals + "GETTABLE 2 0 'print'\n GLOBAL 3 'getmetatable'\n MOVE 4 0\n CALL 3 2 2\n RETURN 2 3", "function:0 table:0");
+        Play.due(globals + "GLOBAL 3 'collect'\n CALL 3 1 2\n GETTABLE 2 0 'type'\n RETURN 2 3", "function:2 61");
     }
 
     private static void looksForEventsWithoutMetamethods() {

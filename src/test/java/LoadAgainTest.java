@@ -44,6 +44,13 @@ public final class LoadAgainTest {
         for (int i = 0; i < 4; i++) {
             again(play, many, "1");
         }
+        StringBuilder upvalues = new StringBuilder("main 3\n CLOSURE 0 f100\n LOADK 1 #6\n CALL 0 1 2\n RETURN 0 2\n");
+        for (int i = 0; i < 101; i++) {
+            upvalues.append("function f").append(i).append(" 0 0 2").append(" r1".repeat(60)).append("\n GETUPVAL 0 59\n RETURN 0 2\n end\n");
+        }
+        for (int i = 0; i < 4; i++) {
+            again(play, upvalues.toString(), "6");
+        }
     }
 
     private static void comesBehindManyObjects() {

@@ -121,6 +121,8 @@ public final class TablesTest {
         String set = "GLOBAL 3 'setmetatable'\n MOVE 4 1\n MOVE 5 0\n CALL 3 3 1\n ";
         first("'x'", "#7", "GETTABLE 2 0 'x'\n RETURN 2 2", "7");
         first("'x'", "#7", "SETTABLE 0 'x' #8\n GETTABLE 2 0 'x'\n GLOBAL 3 'next'\n MOVE 4 0\n LOADK 5 'x'\n CALL 3 3 2\n RETURN 2 3", "8 nil");
+        first("'x'", "#7", "SETTABLE 0 'x' #8\n GLOBAL 2 'next'\n MOVE 3 0\n CALL 2 2 3\n RETURN 2 3", "'x' 8");
+        first("'x'", "#7", "GLOBAL 2 'error'\n SETTABLE 1 '__newindex' 2\n GLOBAL 3 'setmetatable'\n MOVE 4 0\n MOVE 5 1\n CALL 3 3 1\n SETTABLE 0 'x' #8\n GETTABLE 2 0 'x'\n RETURN 2 2", "8");
         first("'x'", "#7", "GLOBAL 3 'rawget'\n MOVE 4 0\n LOADK 5 'x'\n CALL 3 3 2\n RETURN 3 2", "7");
         first("'x'", "#7", "GLOBAL 3 'next'\n MOVE 4 0\n CALL 3 2 3\n RETURN 3 3", "'x' 7");
         first("#1", "#7", "LEN 2 0\n RETURN 2 2", "1");
