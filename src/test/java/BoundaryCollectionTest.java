@@ -63,6 +63,10 @@ public final class BoundaryCollectionTest {
     private static void reachesGlobals() {
         Due.by("REACHED: GLOBALS");
         kept("main 8\n NEWTABLE 0\n SETGLOBAL 'type' 0\n LOADNIL 0 0" + COLLECT, 1);
+        String held = "main 8\n NEWTABLE 0\n NEWTABLE 1\n SETTABLE 0 #1 1\n NEWTABLE 2\n SETTABLE 1 #1 2\n LOADK 3 #1\n LOADK 4 #2\n CONCAT 3 3 4\n SETTABLE 2 #1 3\n SETGLOBAL 'type' 0\n LOADNIL 0 4\n GLOBAL 7 'collect'\n CALL 7 1 1\n GLOBAL 7 'collect'\n CALL 7 1 1\n ";
+        kept(held + COLLECT, 4);
+        kept(held + "SETGLOBAL 'type' nil" + COLLECT, 0);
+        kept(held + "GLOBAL 0 'type'\n SETTABLE 0 #1 nil\n LOADNIL 0 0" + COLLECT, 1);
         Play play = Play.of("main 8\n NEWTABLE 0\n SETGLOBAL 'type' 0\n LOADNIL 0 0\n SETUPVAL 0 0\n RETURN 0 1");
         play.finish();
         Due.is("also when no variable has them", play.x.collect(), 59);

@@ -13,6 +13,7 @@ public final class BoundaryTablesTest {
         dropsDeadOnesOfAFullRoom();
         keepsARoomThatIsHalfEmpty();
         keepsDeadOnesUntilTheRoomIsFull();
+        findsAllOfAFullRoom();
         comesToTheRowsEnd();
         measuresTheLeast();
         findsTheNext();
@@ -94,6 +95,19 @@ public final class BoundaryTablesTest {
         Play.due(three + "GLOBAL 1 'next'\n MOVE 2 0\n LOADK 3 'a'\n CALL 1 3 2\n RETURN 1 2", "'b'");
         Play.due(three + "SETTABLE 0 'a' #5" + WALK, "'abcd'");
         room(three + "SETTABLE 0 'a' #5", 4);
+    }
+
+    /** Four keys that fill a room, as scattered as they may be: of a thousand such rooms no value is missed. */
+    private static void findsAllOfAFullRoom() {
+        Due.by("v is a table, and has a value there");
+        StringBuilder text = new StringBuilder("main 12\n LOADK 0 #0\n LOADK 6 #1\n LOADK 1 #1\n LOADK 2 #1000\n LOADK 3 #1\n FORPREP 1 >next\nbody:\n NEWTABLE 5\n ");
+        for (int key = 8; key < 12; key++) {
+            text.append("MUL 6 6 #6364136223846793005\n ADD 6 6 #1442695040888963407\n MOVE ").append(key).append(" 6\n SETTABLE 5 6 #").append(key).append("\n ");
+        }
+        for (int key = 8; key < 12; key++) {
+            text.append("GETTABLE 7 5 ").append(key).append("\n EQ 1 7 #").append(key).append("\n JMP 0 1\n ADD 0 0 #1\n ");
+        }
+        Play.due(text + "\nnext:\n FORLOOP 1 >body\n RETURN 0 2", "0");
     }
 
     private static void comesToTheRowsEnd() {

@@ -35,6 +35,11 @@ public final class LoadAgainTest {
             play.put(bytes);
             Due.is("load of the whole", play.x.load(), 3);
             Due.is("what it does", play.finish(), "'string'");
+            play.put(Arrays.copyOf(bytes, length));
+            Due.isThrown("load of " + length, () -> play.x.load(), UnsupportedOperationException.class);
+            play.put(Play.with(bytes, 1, 0));
+            Due.isThrown("load of an outermost that takes no more", () -> play.x.load(), UnsupportedOperationException.class);
+            Due.is("its fault", play.x.fault(0) + " at " + play.x.fault(1), "2 at 1");
         }
     }
 
