@@ -219,6 +219,7 @@ public final class BoundaryCollectionTest {
         Due.by("and the metatable");
         String set = "main 8\n NEWTABLE 0\n NEWTABLE 1\n GLOBAL 2 'setmetatable'\n MOVE 3 0\n MOVE 4 1\n CALL 2 3 1\n LOADNIL 1 5";
         kept(set + COLLECT, 2);
+        kept(set.replace("GLOBAL 2 'setmetatable'", "NEWTABLE 2\n SETTABLE 1 #1 2\n GLOBAL 2 'setmetatable'") + COLLECT, 3);
         kept(set + "\n GLOBAL 2 'setmetatable'\n MOVE 3 0\n CALL 2 3 1\n LOADNIL 2 1" + COLLECT, 1);
     }
 

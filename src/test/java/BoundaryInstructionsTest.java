@@ -10,6 +10,7 @@ public final class BoundaryInstructionsTest {
         jumpsFarAndBack();
         closesFromARegisterOn();
         sharesWhateverIsWritten();
+        sharesEachOfSeveral();
         leavesRegistersWhenItWrites();
         testsAndSets();
         callsWithNoneOrMany();
@@ -114,6 +115,16 @@ public final class BoundaryInstructionsTest {
         }
     }
 
+    private static void sharesEachOfSeveral() {
+        Due.by("5 R(A) = U(B).");
+        String f = "\n function f 0 0 5 r0 r1 r2 r3\n GETUPVAL 0 3\n GETUPVAL 1 2\n GETUPVAL 2 1\n GETUPVAL 3 0\n RETURN 0 5\n end";
+        Play.due("main 6\n LOADK 0 'a'\n LOADK 1 #5\n LOADK 2 true\n CLOSURE 4 f\n CALL 4 1 0\n RETURN 4 0" + f, "nil true 5 'a'");
+        Due.by("9 U(B) = R(A).");
+        String set = "\n function set 0 0 5 r0 r1 r2 r3\n LOADK 0 'z'\n LOADK 1 #9\n LOADK 2 false\n SETUPVAL 2 1\n SETUPVAL 1 3\n SETUPVAL 0 2\n RETURN 0 1\n end";
+        Play.due("main 6\n LOADK 0 'a'\n LOADK 1 #5\n LOADK 2 true\n CLOSURE 4 set\n CALL 4 1 1\n RETURN 0 5" + set, "'a' false 'z' 9");
+        Play.due("main 6\n LOADK 0 'a'\n LOADK 1 #5\n LOADK 2 true\n CLOSURE 4 set\n CLOSURE 5 f\n JMP 1 0\n CALL 4 1 1\n CALL 5 1 0\n RETURN 5 0" + set + f, "9 'z' false 'a'");
+    }
+
     private static void leavesRegistersWhenItWrites() {
         Due.by("8 U(A)[RK(B)] = RK(C).");
         String asked = "main 8\n GETUPVAL 1 0\n NEWTABLE 2\n CLOSURE 3 f\n SETTABLE 2 '__newindex' 3\n GLOBAL 3 'setmetatable'\n MOVE 4 1\n MOVE 5 2\n CALL 3 3 1\n LOADK 0 'old'\n %s\n RETURN 0 3\n function f 0 0 2\n LOADK 0 'new'\n RETURN 0 2\n end";
@@ -128,6 +139,7 @@ public final class BoundaryInstructionsTest {
             for (int c = 0; c <= 1; c++) {
                 boolean skips = i > 1 == (c == 0);
                 Play.due("main 3\n LOADK 0 " + values[i] + "\n LOADK 1 #5\n TEST 0 " + c + "\n JMP 0 1\n LOADK 1 #6\n RETURN 1 2", skips ? "6" : "5");
+                Play.due("main 3\n LOADK 0 " + (i > 1 ? "nil" : "true") + "\n LOADK 2 " + values[i] + "\n LOADK 1 #5\n TEST 2 " + c + "\n JMP 0 1\n LOADK 1 #6\n RETURN 1 2", skips ? "6" : "5");
                 Play.due("main 3\n LOADK 0 " + values[i] + "\n LOADK 1 #5\n TESTSET 1 0 " + c + "\n JMP 0 1\n LOADK 1 #6\n RETURN 1 2",
                     skips ? "6" : values[i].replace("#", ""));
             }

@@ -151,6 +151,9 @@ public final class BoundaryMetatablesTest {
         Due.by("called with both (25, 26: twice the one)");
         String f = "\n function f 0 1 6 u0\n GLOBAL 0 'rawequal'\n VARARG 1 0\n CALL 0 0 2\n GLOBAL 1 'select'\n LOADK 2 '#'\n VARARG 3 0\n CALL 1 0 2\n NOT 0 0\n EQ 1 1 #2\n JMP 0 1\n LOADNIL 0 0\n RETURN 0 2\n end";
         Play.due(with("CLOSURE 5 f\n SETTABLE 1 '__unm' 5\n SETTABLE 1 '__bnot' 5", "UNM 5 0\n BNOT 6 0\n RETURN 5 3" + f), "false false");
+        Play.due(with("CLOSURE 5 f\n SETTABLE 1 '__unm' 5\n SETTABLE 1 '__bnot' 5", "MOVE 7 0\n NEWTABLE 0\n UNM 5 7\n BNOT 6 7\n RETURN 5 3" + f), "false false");
+        Play.due(with("CLOSURE 5 f\n SETTABLE 1 '__unm' 5\n SETTABLE 1 '__bnot' 5", "MOVE 7 0\n LOADK 0 #3\n UNM 5 7\n BNOT 6 7\n RETURN 5 3" + f), "false false");
+        Play.due(with("", "LOADK 7 #6\n UNM 5 7\n BNOT 6 7\n RETURN 5 3"), "-6 -7");
     }
 
     private static void asksForTheLength() {
@@ -193,11 +196,11 @@ public final class BoundaryMetatablesTest {
 
     private static void countsResultsAsTruth() {
         Due.by("Results of 31 .. 33 count as true or false.");
-        String[] results = {"RETURN 0 1", "LOADNIL 0 0\n RETURN 0 2", "LOADBOOL 0 0 0\n RETURN 0 2", "LOADK 0 #0\n RETURN 0 2", "LOADK 0 ''\n RETURN 0 2", "LOADNIL 0 0\n LOADBOOL 1 1 0\n RETURN 0 3"};
+        String[] results = {"RETURN 0 1", "LOADNIL 0 0\n RETURN 0 2", "LOADBOOL 0 0 0\n RETURN 0 2", "LOADK 0 #0\n RETURN 0 2", "LOADK 0 ''\n RETURN 0 2", "LOADNIL 0 0\n LOADBOOL 1 1 0\n RETURN 0 3", "LOADBOOL 0 1 0\n RETURN 0 2"};
         for (String operation : new String[] {"EQ", "LT", "LE"}) {
             for (int i = 0; i < results.length; i++) {
                 Play.due(with("CLOSURE 5 f\n SETTABLE 1 '__" + operation.toLowerCase() + "' 5", "NEWTABLE 6\n " + operation + " 0 0 6\n JMP 0 1\n LOADBOOL 5 1 1\n LOADBOOL 5 0 0\n RETURN 5 2\n function f 0 0 3\n " + results[i] + "\n end"),
-                    i == 3 || i == 4 ? "true" : "false");
+                    i == 3 || i == 4 || i == 6 ? "true" : "false");
             }
         }
     }

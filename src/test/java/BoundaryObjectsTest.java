@@ -24,6 +24,7 @@ public final class BoundaryObjectsTest {
         looksAtAllThatIsMadeFirst();
         looksAtAllRoomFirst();
         needsNoMoreThanTheLimit();
+        needsNoMoreThanMayBeMade();
         Due.end();
     }
 
@@ -213,6 +214,9 @@ public final class BoundaryObjectsTest {
         Due.is("the last string is not made", over.x.count(8), 335 + 262_143 + k + 1);
         // a constant of one byte more
         Play one = Play.of(String.format(program, k).replace("RETURN 0 2", "RETURN 0 2\n LOADK 0 'b'\n RETURN 0 2"));
+        // 782 bytes doubled 8 times are 399,602 in all; the last string twice is longer than all may be
+        Play longest = Play.of("main 8\n LOADK 0 '" + "w".repeat(782) + "'\n LOADK 1 #1\n LOADK 2 #8\n LOADK 3 #1\n FORPREP 1 >next\nbody:\n MOVE 5 0\n MOVE 6 0\n CONCAT 0 5 6\nnext:\n FORLOOP 1 >body\n MOVE 1 0\n CONCAT 0 0 1\n RETURN 0 1");
+        Due.is("one string of more than 400,000", longest.finish() + " " + longest.x.count(8), "error 11 " + (335 + 399_602));
         Due.is("one more", one.finish(), "error 11");
         Due.is("the last string is not made", one.x.count(8), 335 + 1 + 262_143 + k);
     }
@@ -263,19 +267,54 @@ public final class BoundaryObjectsTest {
 
     private static void needsNoMoreThanTheLimit() {
         Due.by("IllegalStateException: it needs more than LIMIT OBJECTS (nothing is collected in load)");
-        for (int strings : new int[] {140, 141}) {
+        for (int strings : new int[] {139, 140, 141, 142, 143, 144, 300}) {
             Play play = new Play();
             play.x.limit(200);
             StringBuilder text = new StringBuilder("main 2\n");
             for (int i = 0; i < strings; i++) {
                 text.append("LOADK 0 'n").append(i).append("'\n");
             }
-            play.put(Assembler.chunk(text + "RETURN 0 1"));
-            if (strings == 140) {
-                Due.is("200 objects", play.x.load() + " " + play.x.count(3) + " " + play.x.count(5), "1 200 0");
-            } else {
-                Due.isThrown("201 objects", () -> play.x.load(), IllegalStateException.class);
-            }
+            loads(play, text + "RETURN 0 1", strings <= 140);
+            Due.is("existing and collections", play.x.count(3) + " " + play.x.count(5), (strings <= 140 ? 60 + strings : 0) + " 0");
+        }
+    }
+
+    private static void loads(Play play, String program, boolean right) {
+        play.put(Assembler.chunk(program));
+        String got = "loaded";
+        try {
+            play.x.load();
+        } catch (IllegalStateException e) {
+            got = "IllegalStateException";
+        }
+        Due.is("load", got, right ? "loaded" : "IllegalStateException");
+        Due.is("frames and fault behind it", play.x.count(9) + " " + play.x.fault(0) + " " + play.x.fault(1), (right ? 1 : 0) + " 0 -1");
+    }
+
+    private static void needsNoMoreThanMayBeMade() {
+        Due.by("or what may be made in all, before the first STEP (there is no CHUNK then, and no FAULT)");
+        for (int left : new int[] {61, 60, 59, 58, 57, 1}) {
+            Play play = Play.of(GARBAGE);
+            play.x.run(100_000);
+            play.x.run(2 * (60_000 - 60 - left - 50_000));
+            Due.is("made", play.x.count(4), 60_000 - left);
+            loads(play, "main 2\n RETURN 0 1", left >= 60);
+        }
+        // closures of 7 upvalues, and a last one of some more
+        for (int left : new int[] {62, 61, 60, 59, 57, 40}) {
+            Play play = Play.of("main 8\n LOADK 1 #1\n LOADK 2 #42839\n LOADK 3 #1\n FORPREP 1 >next\nbody:\n CLOSURE 5 g\nnext:\n FORLOOP 1 >body\n CLOSURE 5 h\n RETURN 0 1\n"
+                + "function g 0 0 2" + " u0".repeat(7) + "\n RETURN 0 1\n end\n function h 0 0 2" + " u0".repeat(66 - left) + "\n RETURN 0 1\n end");
+            play.finish();
+            Due.is("room made", play.x.count(7), 300_000 - left);
+            loads(play, "main 2\n RETURN 0 1", left >= 61);
+        }
+        // "a" doubled, and two of its strings more, leave 500 bytes
+        for (int constant : new int[] {164, 165, 166}) {
+            Play play = Play.of("main 8\n LOADK 0 'a'\n LOADK 1 #1\n LOADK 2 #17\n LOADK 3 #1\n FORPREP 1 >next\nbody:\n MOVE 5 0\n MOVE 6 0\n CONCAT 0 5 6\nnext:\n FORLOOP 1 >body\n"
+                + "GLOBAL 1 'sub'\n MOVE 2 0\n LOADK 3 #1\n LOADK 4 #2975\n CALL 1 4 2\n CONCAT 0 0 1\n LEN 0 0\n RETURN 0 2");
+            play.finish();
+            Due.is("bytes made", play.x.count(8), 399_500);
+            loads(play, "main 2\n LOADK 0 '" + "c".repeat(constant) + "'\n RETURN 0 1", constant <= 165);
         }
     }
 }
