@@ -208,6 +208,12 @@ public final class BoundaryValuesTest {
         reckonedRow("'a' ''", "'a'");
         reckonedRow("#1 'a'", "'1a'");
         reckonedRow("'a' #0", "'a0'");
+        for (int length : new int[] {1_003, 1_004, 1_005, 1_023, 1_024, 1_025, 2_047, 2_048, 2_049, 4_096}) {
+            String whole = "y".repeat(length);
+            reckonedRow("'" + whole + "' " + LEAST, "'" + whole + "-9223372036854775808'");
+            reckonedRow(LEAST + " '" + whole + "'", "'-9223372036854775808" + whole + "'");
+            reckonedRow("'" + whole + "' '" + whole + "'", "'" + whole + whole + "'");
+        }
         for (String wrong : new String[] {"nil", "true", "false"}) {
             reckonedRow("'a' " + wrong, "error 3");
             reckonedRow(wrong + " 'a'", "error 3");
