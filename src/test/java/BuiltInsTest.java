@@ -24,6 +24,7 @@ public final class BuiltInsTest {
     }
 
     private static void makesTexts() {
+        Due.by("\"tostring\": nil, true, false, integers decimal, strings as they are; tables with __tostring: called with it, which must give a string (else ERROR 3);");
         called("tostring nil", "'nil'");
         called("tostring true", "'true'");
         called("tostring false", "'false'");
@@ -119,6 +120,7 @@ public final class BuiltInsTest {
         }
         called("byte ''", "nil");
         called("byte #1", "error 3");
+        Due.by("\"len\" (string). ERROR 3: no string");
         called("len 'abc'", "3");
         called("len #1", "error 3");
         called("len {}", "error 3");

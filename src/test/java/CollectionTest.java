@@ -168,6 +168,7 @@ public final class CollectionTest {
 
     /** One program with tables, strings, closures, coroutines and errors, at each limit and with collections between its steps. */
     private static void isNotNoticed() {
+        Due.by("a collector that keeps memory small and is never noticed but by its counts");
         String program = "main 12\n NEWTABLE 0\n LOADK 1 #1\n LOADK 2 #60\n LOADK 3 #1\n LOADK 9 ''\n FORPREP 1 >next\nbody:\n"
             + "GLOBAL 5 'wrap'\n CLOSURE 6 f\n CALL 5 2 2\n MOVE 6 5\n MOVE 7 4\n CALL 6 2 2\n MOVE 7 6\n MOVE 8 9\n CONCAT 9 7 8\n GLOBAL 10 'sub'\n MOVE 11 9\n CALL 10 2 2\n"
             + "GLOBAL 6 'pcall'\n MOVE 7 5\n LOADK 8 '.'\n CALL 6 3 3\n MOVE 8 9\n CONCAT 9 7 8\n LEN 6 9\n LT 1 6 #200\n JMP 0 >short\n GLOBAL 6 'sub'\n MOVE 7 9\n LOADK 8 #1\n CALL 6 3 2\n MOVE 9 6\n LOADK 9 'cut'\nshort:\n"

@@ -16,6 +16,7 @@ public final class CoroutinesTest {
     }
 
     private static void passesValuesBothWays() {
+        Due.by("\"yield\": the coroutine gives way with its arguments; what it is resumed with is the result; ERROR 9 in the main one.");
         String f = "\n function f 2 0 6 u0\n GLOBAL 2 'yield'\n ADD 3 0 1\n CALL 2 2 3\n ADD 4 2 3\n RETURN 2 4\n end";
         String begin = "main 12\n GLOBAL 0 'create'\n CLOSURE 1 f\n CALL 0 2 2\n GLOBAL 1 'resume'\n MOVE 2 0\n LOADK 3 #5\n LOADK 4 #6\n CALL 1 4 3\n";
         Play.due(begin + "RETURN 1 3" + f, "true 11");
@@ -27,6 +28,7 @@ public final class CoroutinesTest {
     }
 
     private static void tellsStates() {
+        Due.by("\"suspended\", \"running\", \"normal\" or \"dead\"; \"running\": the coroutine (main: itself) and whether it is the main one.");
         Play.due("main 8\n GLOBAL 0 'running'\n CALL 0 1 3\n GLOBAL 2 'status'\n MOVE 3 0\n CALL 2 2 2\n RETURN 0 4", "coroutine:59 true 'running'");
         Play.due("main 8\n GLOBAL 0 'create'\n CLOSURE 1 f\n CALL 0 2 2\n SETGLOBAL 'c' 0\n GLOBAL 1 'running'\n CALL 1 1 2\n SETGLOBAL 'm' 1\n GLOBAL 1 'status'\n MOVE 2 0\n CALL 1 2 2\n"
             + "GLOBAL 2 'resume'\n MOVE 3 0\n CALL 2 2 5\n GLOBAL 6 'status'\n MOVE 7 0\n CALL 6 2 2\n RETURN 1 7\n"
@@ -38,6 +40,7 @@ public final class CoroutinesTest {
     }
 
     private static void endsByErrors() {
+        Due.by("false and the ERROR, if it ends by one;");
         Play.due("main 8\n GLOBAL 0 'create'\n CLOSURE 1 f\n CALL 0 2 2\n GLOBAL 1 'resume'\n MOVE 2 0\n CALL 1 2 3\n GLOBAL 3 'status'\n MOVE 4 0\n CALL 3 2 2\n RETURN 1 4\n"
             + "function f 0 0 3\n ADD 0 0 0\n RETURN 0 1\n end", "false 3 'dead'");
         Play.due("main 8\n GLOBAL 0 'create'\n CLOSURE 1 f\n CALL 0 2 2\n GLOBAL 1 'resume'\n MOVE 2 0\n CALL 1 2 0\n RETURN 1 0\n"
@@ -45,6 +48,7 @@ public final class CoroutinesTest {
     }
 
     private static void wraps() {
+        Due.by("\"wrap\" (as create): a function that resumes a new coroutine, which is made first, giving its results, or raising its ERROR (9 likewise).");
         String f = "\n function f 1 0 6 u0\n GLOBAL 1 'yield'\n MOVE 2 0\n CALL 1 2 2\n LOADK 2 #8\n RETURN 1 3\n end\n function bad 0 0 3\n ADD 0 0 0\n RETURN 0 1\n end";
         String begin = "main 8\n GLOBAL 0 'wrap'\n CLOSURE 1 f\n CALL 0 2 2\n MOVE 1 0\n LOADK 2 #4\n CALL 1 2 2\n MOVE 2 0\n LOADK 3 #5\n CALL 2 2 3\n";
         Play.due(begin + "RETURN 1 4" + f, "4 5 8");
@@ -58,6 +62,7 @@ public final class CoroutinesTest {
 
     /** In metamethods of each kind, in an iterator, in pcall, in tostring. */
     private static void givesWayAnywhere() {
+        Due.by("coroutines that give way anywhere");
         String[] bodies = {"GETTABLE 1 0 'x'", "ADD 1 0 #1", "UNM 1 0", "LEN 1 0", "LOADK 1 'a'\n MOVE 2 0\n CONCAT 1 1 2", "MOVE 1 0\n CALL 1 1 2",
             "GLOBAL 1 'pcall'\n GLOBAL 2 'yield'\n LOADK 3 #1\n CALL 1 3 3\n MOVE 1 2", "MOVE 1 0\n TFORCALL 1 1\n MOVE 1 4"};
         for (String body : bodies) {

@@ -13,6 +13,7 @@ public final class ErrorsTest {
     }
 
     private static void goToTheNearestPcall() {
+        Due.by("ERRORS that the machine raises are integers. One is given to the nearest \"pcall\" that is under way in the coroutine");
         Play.due("main 4\n GLOBAL 0 'pcall'\n GLOBAL 1 'error'\n LOADK 2 #5\n CALL 0 3 0\n RETURN 0 0", "false 5");
         Play.due("main 4\n GLOBAL 0 'pcall'\n GLOBAL 1 'type'\n LOADK 2 #5\n CALL 0 3 0\n RETURN 0 0", "true 'number'");
         Play.due("main 4\n GLOBAL 0 'pcall'\n GLOBAL 1 'pcall'\n GLOBAL 2 'error'\n LOADK 3 #5\n CALL 0 4 0\n RETURN 0 0", "true false 5");
@@ -22,6 +23,7 @@ public final class ErrorsTest {
     }
 
     private static void closeVariables() {
+        Due.by("(all FRAMES above it go, their variables CLOSED first, from the newest)");
         Play.due("main 4\n GLOBAL 0 'pcall'\n CLOSURE 1 f\n CALL 0 2 1\n GLOBAL 0 'get'\n CALL 0 1 2\n RETURN 0 2\n"
             + "function f 0 0 3 u0\n LOADK 0 #1\n CLOSURE 1 get\n SETGLOBAL 'get' 1\n LOADK 0 #2\n ADD 1 1 1\n RETURN 0 1\n function get 0 0 2 r0\n GETUPVAL 0 0\n RETURN 0 2\n end\n end", "2");
     }
@@ -35,6 +37,7 @@ public final class ErrorsTest {
     }
 
     private static void areAnyValues() {
+        Due.by("\"error\": its argument is the ERROR.");
         Play.due("main 4\n GLOBAL 0 'pcall'\n GLOBAL 1 'error'\n LOADBOOL 2 0 0\n CALL 0 3 0\n RETURN 0 0", "false false");
         Play.due("main 4\n GLOBAL 0 'pcall'\n GLOBAL 1 'error'\n CALL 0 2 0\n RETURN 0 0", "false nil");
         Play.due("main 4\n GLOBAL 0 'pcall'\n GLOBAL 1 'error'\n LOADK 2 #11\n CALL 0 3 0\n RETURN 0 0", "false 11");

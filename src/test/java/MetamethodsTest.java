@@ -21,6 +21,7 @@ public final class MetamethodsTest {
     }
 
     private static void reads() {
+        Due.by("v[k]: v is a table, and has a value there, or no __index: that; no table: ERROR 2. Else h, its __index: a function: called with v and k, its first result; else h[k], by the same rule;");
         Play.due(with("SETTABLE 1 'x' #5\n SETTABLE 1 '__index' 1", "GETTABLE 5 0 'x'\n GETTABLE 6 0 'y'\n RETURN 5 3"), "5 nil");
         Play.due(with("SETTABLE 1 'x' #5\n SETTABLE 1 '__index' 1", "SETTABLE 0 'x' #6\n GETTABLE 5 0 'x'\n RETURN 5 2"), "6");
         Play.due(with("CLOSURE 5 f\n SETTABLE 1 '__index' 5", "GETTABLE 5 0 'x'\n SELF 6 0 nil\n EQ 1 5 0\n JMP 0 1\n LOADNIL 5 0\n EQ 1 6 0\n JMP 0 1\n LOADNIL 5 0\n RETURN 5 2" + F), "table:61");
@@ -32,6 +33,7 @@ public final class MetamethodsTest {
     }
 
     private static void writes() {
+        Due.by("v[k] = x: v is a table and has a value there, or no __newindex: written; no table: ERROR 2; h: a function: called with v, k, x; else h[k] = x; likewise.");
         Play.due(with("NEWTABLE 5\n SETTABLE 1 '__newindex' 5", "SETTABLE 0 'x' #4\n GETTABLE 6 0 'x'\n GETTABLE 7 5 'x'\n RETURN 6 3"), "nil 4");
         Play.due(with("NEWTABLE 5\n SETTABLE 1 '__newindex' 5\n SETTABLE 0 'x' #3", "SETTABLE 0 'x' #4\n GETTABLE 6 0 'x'\n GETTABLE 7 5 'x'\n RETURN 6 3"), "4 nil");
         Play.due(with("CLOSURE 5 f\n SETTABLE 1 '__newindex' 5", "SETTABLE 0 'x' #4\n GLOBAL 6 'key'\n GLOBAL 7 'value'\n GETTABLE 8 0 'x'\n RETURN 6 4\n"
@@ -42,6 +44,7 @@ public final class MetamethodsTest {
     }
 
     private static void reckonsAndCompares() {
+        Due.by("else the first of the two that has it (a table with __add, __sub, __mul, __mod, __idiv, __band, __bor, __bxor, __shl, __shr, __unm, __bnot): called with both (25, 26: twice the one); none: ERROR 3.");
         String[] operations = {"ADD", "SUB", "MUL", "MOD", "IDIV", "BAND", "BOR", "BXOR", "SHL", "SHR"};
         String[] events = {"add", "sub", "mul", "mod", "idiv", "band", "bor", "bxor", "shl", "shr"};
         for (int i = 0; i < operations.length; i++) {
@@ -50,6 +53,7 @@ public final class MetamethodsTest {
             Play.due(with("", operations[i] + " 5 0 #7\n RETURN 5 2"), "error 3");
         }
         Play.due(with("CLOSURE 5 f\n SETTABLE 1 '__unm' 5\n SETTABLE 1 '__bnot' 5", "UNM 5 0\n BNOT 6 0\n RETURN 5 3\n function f 0 1 4\n VARARG 0 3\n EQ 1 0 1\n JMP 0 1\n LOADNIL 0 0\n VARARG 2 0\n RETURN 0 0\n end"), "table:60 table:60");
+        Due.by("31: the same; or both tables, and the first that has __eq: called with both. 32, 33: both integers; both strings; else the first that has __lt, __le, called with both; none: ERROR 3. Results of 31 .. 33 count as true or false.");
         String yes = "CLOSURE 5 f\n SETTABLE 1 '__eq' 5\n SETTABLE 1 '__lt' 5\n SETTABLE 1 '__le' 5";
         String f = "\n function f 2 0 3\n LOADK 0 #0\n RETURN 0 2\n end";
         Play.due(with(yes, "NEWTABLE 6\n EQ 1 6 0\n JMP 0 1\n RETURN 0 1\n LT 1 0 6\n JMP 0 1\n RETURN 0 1\n LE 1 #1 0\n JMP 0 1\n RETURN 0 1\n LOADK 5 #1\n RETURN 5 2" + f), "1");
@@ -63,6 +67,7 @@ public final class MetamethodsTest {
     }
 
     private static void measuresAndJoins() {
+        Due.by("28: strings: bytes; tables: __len called with it, else LENGTH; else ERROR 2. 29: from the right, two at a time: both strings or integers: joined; else the first that has __concat, called with both, its first result alone counting; none: ERROR 3.");
         Play.due(with("GLOBAL 5 'type'\n SETTABLE 1 '__len' 5", "LEN 5 0\n RETURN 5 2"), "'table'");
         Play.due(with("CLOSURE 5 f\n SETTABLE 1 '__len' 5", "LEN 5 0\n RETURN 5 2\n function f 0 1 4 u0\n GLOBAL 0 'select'\n LOADK 1 '#'\n VARARG 2 0\n TAILCALL 0 0\n end"), "1");
         Play.due(with("SETTABLE 0 #1 #1", "LEN 5 0\n RETURN 5 2"), "1");
@@ -74,6 +79,7 @@ public final class MetamethodsTest {
     }
 
     private static void calls() {
+        Due.by("Called: a function; else a table's __call, with it before the arguments (again by the same rule; ERROR 4 at the 100th); else ERROR 1.");
         Play.due(with("CLOSURE 5 f\n SETTABLE 1 '__call' 5", "MOVE 5 0\n LOADK 6 #1\n LOADK 7 #2\n CALL 5 3 4\n RETURN 5 4" + F), "table:60 1 2");
         Play.due(with("SETTABLE 1 '__call' 1", "MOVE 5 0\n CALL 5 1 1\n RETURN 0 1"), "error 1");
         Play.due(with("", "MOVE 5 0\n CALL 5 1 1\n RETURN 0 1"), "error 1");
@@ -89,6 +95,7 @@ public final class MetamethodsTest {
     }
 
     private static void followsChainsUpToTheHundredth() {
+        Due.by("ERROR 4 at the 100th such.");
         Play.due(chain("__index", 99, "SETTABLE 1 'x' #3\n GETTABLE 5 0 'x'\n RETURN 5 2"), "3");
         Play.due(chain("__index", 99, "GETTABLE 5 0 'x'\n RETURN 5 2"), "nil");
         Play.due(chain("__index", 100, "SETTABLE 1 'x' #3\n GETTABLE 5 0 'x'\n RETURN 5 2"), "error 4");
@@ -103,6 +110,7 @@ public final class MetamethodsTest {
     }
 
     private static void asksTheFirstThatHasIt() {
+        Due.by("else the first of the two that has it");
         String two = "main 12\n NEWTABLE 0\n NEWTABLE 1\n NEWTABLE 2\n NEWTABLE 3\n CLOSURE 4 f\n CLOSURE 5 g\n SETTABLE 2 '__add' 4\n SETTABLE 3 '__add' 5\n SETTABLE 3 '__sub' 5\n SETTABLE 2 '__lt' 4\n SETTABLE 3 '__lt' 5\n"
             + "GLOBAL 6 'setmetatable'\n MOVE 7 0\n MOVE 8 2\n CALL 6 3 1\n GLOBAL 6 'setmetatable'\n MOVE 7 1\n MOVE 8 3\n CALL 6 3 1\n";
         String both = "\n function f 0 0 2\n LOADK 0 'f'\n RETURN 0 2\n end\n function g 0 0 2\n LOADK 0 'g'\n RETURN 0 2\n end";
@@ -110,6 +118,7 @@ public final class MetamethodsTest {
     }
 
     private static void countsOnlyFirstResults() {
+        Due.by("called with v and k, its first result;");
         Play.due(with("CLOSURE 5 f\n SETTABLE 1 '__index' 5\n SETTABLE 1 '__add' 5", "LOADK 6 #1\n LOADK 7 #2\n GETTABLE 5 0 'x'\n ADD 6 0 0\n RETURN 5 4\n function f 0 0 4\n LOADK 0 #8\n LOADK 1 #9\n RETURN 0 3\n end"), "8 8 2");
         Play.due(with("CLOSURE 5 f\n SETTABLE 1 '__index' 5", "LOADK 5 #1\n GETTABLE 5 0 'x'\n RETURN 5 2\n function f 0 0 4\n RETURN 0 1\n end"), "nil");
     }

@@ -25,7 +25,8 @@ public final class Promise04LoadTest {
 
     /** Globals 0, 56 names, the variable, the constants' strings, the closure, the main coroutine. */
     private static void makesWhatItMakesInOrder() {
-        Due.by("LOAD makes, in this order");
+        Due.by("LOAD makes, in this order: GLOBALS; strings: BUILT IN names as above; __index __newindex __call __add __sub __mul __mod __idiv __band __bor __bxor __shl __shr __unm __bnot __concat __len __eq __lt __le __tostring __metatable;"
+            + " nil boolean number string table function thread; suspended running normal dead; the outermost's upvalue's variable; the constants' strings as they stand in the CHUNK; GLOBALS' ENTRIES (with their ROOM); the outermost's closure; the main coroutine.");
         Due.is("numbers without strings of its own", Play.answer("main 4\n GETUPVAL 0 0\n GLOBAL 1 'running'\n CALL 1 1 2\n NEWTABLE 2\n RETURN 0 4"),
             "table:0 coroutine:59 table:60");
         Due.is("numbers with two strings of its own, one of them twice, one built in",

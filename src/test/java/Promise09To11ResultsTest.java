@@ -8,7 +8,7 @@ public final class Promise09To11ResultsTest {
     }
 
     private static void tellsEachKind() {
-        Due.by("An integer result itself; of a string its length, of others the OBJECT's number (built in: place in the list), else 0.");
+        Due.by("Result k, from 0, of the main coroutine, or (0) its ERROR: 0 nil, 1 false, 2 true, 3 integer, 4 string, 5 table, 6 function, 7 coroutine.");
         Play play = Play.of("main 12\n LOADNIL 0 0\n LOADBOOL 1 0 0\n LOADBOOL 2 1 0\n LOADK 3 #-9223372036854775808\n LOADK 4 'a\u00ff'\n LOADK 5 ''\n"
             + "GETUPVAL 6 0\n CLOSURE 7 f\n GLOBAL 8 'collect'\n GLOBAL 9 'print'\n GLOBAL 10 'running'\n CALL 10 1 2\n RETURN 0 12\n"
             + "function f 0 0 2\n RETURN 0 1\n end");
@@ -17,6 +17,9 @@ public final class Promise09To11ResultsTest {
         long[] values = {0, 0, 0, Long.MIN_VALUE, 2, 0, 0, 62, 23, 0, 61};
         for (int k = 0; k < kinds.length; k++) {
             Due.is("kind(" + k + ")", play.x.kind(k), kinds[k]);
+        }
+        Due.by("An integer result itself; of a string its length, of others the OBJECT's number (built in: place in the list), else 0.");
+        for (int k = 0; k < values.length; k++) {
             Due.is("value(" + k + ")", play.x.value(k), values[k]);
         }
         Due.by("IndexOutOfBoundsException: there is none.");

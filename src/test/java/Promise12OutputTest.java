@@ -8,7 +8,7 @@ public final class Promise12OutputTest {
     }
 
     private static void printsEachKind() {
-        Due.by("Byte i of the OUTPUT");
+        Due.by("in the GLOBALS, a table that is the value of the outermost's upvalue, by name: \"print\": each argument as \"tostring\" would give it (but nothing is made, no metamethod asked for), a tab between, a line feed behind, to the OUTPUT.");
         Play play = Play.of("main 12\n GLOBAL 0 'print'\n LOADNIL 1 0\n LOADBOOL 2 0 0\n LOADBOOL 3 1 0\n LOADK 4 #-12\n LOADK 5 'x\u00fe'\n GETUPVAL 6 0\n"
             + "GLOBAL 7 'type'\n CLOSURE 8 f\n GLOBAL 9 'running'\n CALL 9 1 2\n CALL 0 10 1\n GLOBAL 0 'print'\n CALL 0 1 1\n GLOBAL 0 'print'\n"
             + "LOADK 1 #-9223372036854775808\n LOADK 2 #0\n CALL 0 3 2\n RETURN 0 2\n function f 0 0 2\n RETURN 0 1\n end");
@@ -16,6 +16,7 @@ public final class Promise12OutputTest {
         Due.is("what print gives", play.finish(), "nil");
         String want = "nil\tfalse\ttrue\t-12\tx\u00fe\ttable: 0\tbuiltin: 2\tfunction: 61\tthread: 60\n\n-9223372036854775808\t0\n";
         Due.is("output", play.printed(), want);
+        Due.by("Byte i of the OUTPUT");
         Due.is("a byte above 127", play.x.output(want.indexOf('\u00fe')), 254);
         Due.isThrown("output(-1)", () -> play.x.output(-1), IndexOutOfBoundsException.class);
         Due.isThrown("output behind the end", () -> play.x.output(want.length()), IndexOutOfBoundsException.class);

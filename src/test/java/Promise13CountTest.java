@@ -43,6 +43,7 @@ public final class Promise13CountTest {
         Due.is("a closure more", play.counts(1, 11), "0 11 66 66 0 40 79 340 1 0 1");
         play.x.run(1);
         Due.is("at the end", play.counts(1, 11), "0 12 66 66 0 40 79 340 0 0 1");
+        Due.by("EXISTING: those made and not collected; ROOMS: the sum of ROOMS of existing tables.");
         play.x.collect();
         Due.is("behind a collection", play.counts(1, 11), "0 12 58 66 1 32 79 340 0 0 1");
     }

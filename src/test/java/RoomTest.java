@@ -5,6 +5,7 @@ public final class RoomTest {
     private static final long FEW_BYTES = 1_000_000;
 
     public static void main(String[] args) {
+        Due.by("All memory is the machine's own.");
         isFree("errors", "main 8\n CLOSURE 0 f\nagain:\n GLOBAL 1 'pcall'\n MOVE 2 0\n CALL 1 2 1\n JMP 0 >again\n function f 0 0 3 u0\n ADD 0 0 0\n RETURN 0 1\n end");
         isFree("coroutines", "main 8\n GLOBAL 0 'wrap'\n CLOSURE 1 f\n CALL 0 2 2\nagain:\n MOVE 1 0\n LOADK 2 #1\n CALL 1 2 1\n JMP 0 >again\n"
             + "function f 0 1 4 u0\nagain:\n GLOBAL 0 'yield'\n VARARG 1 0\n CALL 0 0 1\n JMP 0 >again\n end");
